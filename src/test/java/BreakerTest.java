@@ -1,0 +1,154 @@
+/** Promises 11 and 14: stick and tie; how the tie closes (step 2). */
+public final class BreakerTest {
+    public static void main(String[] args) {
+        stick();
+        tie();
+        tieOfDeadSides();
+        tieOfOneLiveSide();
+        tieOfLiveSides();
+        tieThatSticks();
+        Check.end("BreakerTest");
+    }
+
+    private static void stick() {
+        ShipPower x = new ShipPower();
+        for (int breaker = 0; breaker < 9; breaker++) {
+            Check.yes("sticks " + breaker, x.stick(breaker, true));
+            Check.yes("again " + breaker, x.stick(breaker, true));
+            Check.yes("no more " + breaker, x.stick(breaker, false));
+        }
+        Check.no("breaker -1", x.stick(-1, true));
+        Check.no("breaker 9", x.stick(9, true));
+        Check.no("breaker 38, whose bit is that of 6", x.stick(38, true));
+        Check.yes("the tie opens", x.tie(false));
+
+        ShipPower y = Scene.with(0);
+        y.stick(0, true);
+        y.start(0);
+        Scene.run(y, 29);
+        Check.same("nothing was to close yet", y.count(8), 0);
+        Scene.run(y, 3);
+        Check.same("IDLE still", Scene.state(y, 0), Scene.IDLE);
+        Check.same("three ticks it was to close", y.count(8), 3);
+        y.stick(0, false);
+        Scene.run(y, 1);
+        Check.same("ON", Scene.state(y, 0), Scene.ON);
+        Check.same("no more than three", y.count(8), 3);
+    }
+
+    private static void tie() {
+        ShipPower x = new ShipPower();
+        Check.no("closed already", x.tie(true));
+        Check.same("no order of that", x.count(7), 0);
+        Check.yes("opened", x.tie(false));
+        Check.same("breaker 6 is open", x.count(6), 128);
+        Check.same("an event", Scene.happened(x, 0), 1106);
+        Check.no("open already", x.tie(false));
+        Check.yes("ordered", x.tie(true));
+        Check.same("is told", x.count(7), 1);
+        Check.no("ordered already", x.tie(true));
+        Check.same("open as yet", x.count(6), 128);
+        Check.no("open already, but", x.tie(false));
+        Check.same("the order is gone", x.count(7), 0);
+        x.tick();
+        Check.same("it stays open", x.count(6), 128);
+        x.stick(6, true);
+        Check.no("open already, and sticks", x.tie(false));
+        Check.same("it was not to open", x.count(8), 0);
+        Check.yes("the order may be given", x.tie(true));
+
+        ShipPower y = new ShipPower();
+        y.stick(6, true);
+        Check.no("sticks", y.tie(false));
+        Check.same("is counted", y.count(8), 1);
+        Check.same("closed", y.count(6), 192);
+        Check.same("no event", y.count(5), 0);
+    }
+
+    private static void tieOfDeadSides() {
+        ShipPower x = new ShipPower();
+        x.tie(false);
+        x.tie(true);
+        Check.same("closes", x.tick(), 192);
+        Check.same("the order is gone", x.count(7), 0);
+        Check.same("an event", Scene.happened(x, 0), 11006);
+    }
+
+    private static void tieOfOneLiveSide() {
+        for (int live = 0; live < 2; live++) {
+            ShipPower x = Scene.with(2 * live);
+            x.tie(false);
+            x.start(2 * live);
+            Scene.run(x, 40);
+            Check.same("one side is dead", x.bus(1 - live, 5), 0);
+            int frequency = x.bus(live, 0);
+            x.tie(true);
+            x.tick();
+            Check.same("one group", x.bus(1, 2), 0);
+            Check.same("live by that", x.bus(1 - live, 5), 1);
+            Check.same("the live side's frequency", x.bus(1 - live, 0), frequency + 40);
+            Check.same("and phase", x.bus(1 - live, 1), x.bus(live, 1));
+        }
+    }
+
+    private static void tieOfLiveSides() {
+        ShipPower x = Scene.with(0, 2);
+        x.tie(false);
+        x.start(0);
+        x.start(2);
+        Scene.run(x, 30);
+        // Nearly 60600 against nearly 60540: on both sides the phases drift apart and meet again.
+        Scene.asked(x, 1, 5, 50, 10);
+        Scene.run(x, 300);
+        x.tie(true);
+        int waited = 0;
+        boolean closed = false;
+        while (!closed && waited < 90) {
+            boolean due = Math.abs(x.bus(0, 0) - x.bus(1, 0)) <= 150 && angle(x.bus(0, 1), x.bus(1, 1)) <= 5000;
+            x.tick();
+            waited++;
+            closed = Scene.isClosed(x, 6);
+            Check.same("closes just when they are in step", closed ? 1 : 0, due ? 1 : 0);
+        }
+        Check.yes("it had to wait", waited > 10);
+        Check.same("all have bus 0's frequency", x.bus(1, 0), x.bus(0, 0));
+        Check.same("60600 less the way to 60570", x.bus(0, 0), 60570);
+        Check.same("the order is gone", x.count(7), 0);
+
+        ShipPower far = Scene.with(0, 2);
+        far.tie(false);
+        far.start(0);
+        far.start(2);
+        Scene.run(far, 30);
+        Scene.asked(far, 1, 5, 126, 10);
+        Scene.run(far, 100);
+        far.tie(true);
+        Check.same("151 apart: not ever", far.bus(0, 0) - far.bus(1, 0), 151);
+        Scene.run(far, 1000);
+        Check.no("still open", Scene.isClosed(far, 6));
+        Check.same("still ordered", far.count(7), 1);
+        Scene.asked(far, 0, 5, 1, 10);
+        Scene.run(far, 1);
+        Check.same("150 apart", far.bus(0, 0) - far.bus(1, 0), 150);
+        Scene.run(far, 140);
+        Check.yes("closed", Scene.isClosed(far, 6));
+    }
+
+    private static int angle(int a, int b) {
+        int way = Math.abs(a - b);
+        return Math.min(way, 180000 - way);
+    }
+
+    private static void tieThatSticks() {
+        ShipPower x = new ShipPower();
+        x.tie(false);
+        x.tie(true);
+        x.stick(6, true);
+        Scene.run(x, 3);
+        Check.same("was to close each tick", x.count(8), 3);
+        Check.same("the order stays", x.count(7), 1);
+        x.stick(6, false);
+        Scene.run(x, 1);
+        Check.same("closes", x.count(6), 192);
+    }
+}

@@ -1,0 +1,86 @@
+/** Promise 15: bus; groups, leads, what is live. */
+public final class BusTest {
+    public static void main(String[] args) {
+        leads();
+        wholeGroup();
+        deadBus();
+        wrongOnes();
+        Check.end("BusTest");
+    }
+
+    private static void leadsAre(String what, ShipPower x, int lead0, int lead1, int lead2) {
+        Check.same(what + ": bus 0", x.bus(0, 2), lead0);
+        Check.same(what + ": bus 1", x.bus(1, 2), lead1);
+        Check.same(what + ": bus 2", x.bus(2, 2), lead2);
+    }
+
+    private static void leads() {
+        ShipPower x = new ShipPower();
+        leadsAre("6 and 7", x, 0, 0, 0);
+        x.tie(false);
+        leadsAre("7", x, 0, 1, 0);
+        x.start(4);
+        Scene.run(x, 30);
+        leadsAre("none", x, 0, 1, 2);
+        x.tie(true);
+        Scene.run(x, 1);
+        leadsAre("6", x, 0, 0, 2);
+
+        ShipPower y = Scene.with(2);
+        y.tie(false);
+        y.start(2);
+        Scene.run(y, 30);
+        Check.same("8 is closed", y.count(6), 1 << 8 | 1 << 2);
+        leadsAre("8", y, 0, 1, 1);
+        y.tie(true);
+        Scene.run(y, 1);
+        leadsAre("6 and 8", y, 0, 0, 0);
+    }
+
+    private static void wholeGroup() {
+        ShipPower x = Scene.running(0);
+        Scene.asked(x, 0, 5, 10, 10);
+        Scene.asked(x, 1, 5, 20, 10);
+        Scene.asked(x, 2, 5, 40, 10);
+        Scene.run(x, 50);
+        for (int bus = 0; bus < 3; bus++) {
+            Check.same("frequency", x.bus(bus, 0), 60516);
+            Check.same("phase", x.bus(bus, 1), x.bus(0, 1));
+            Check.same("demand", x.bus(bus, 3), 70);
+            Check.same("capacity", x.bus(bus, 4), 1000);
+            Check.same("live", x.bus(bus, 5), 1);
+        }
+        int phase = x.bus(0, 1);
+        x.tick();
+        Check.same("the phase grows by 9 * frequency", x.bus(0, 1), (phase + 9 * 60516) % 180000);
+        x.tie(false);
+        Check.same("demand without bus 1", x.bus(0, 3), 50);
+        Check.same("demand of bus 1", x.bus(1, 3), 20);
+        Check.same("no capacity there", x.bus(1, 4), 0);
+    }
+
+    private static void deadBus() {
+        ShipPower x = Scene.running(0);
+        Scene.run(x, 50);
+        x.tie(false);
+        Check.same("bus 1: no frequency", x.bus(1, 0), 0);
+        Check.same("bus 1: no phase", x.bus(1, 1), 0);
+        Check.same("bus 1: not live", x.bus(1, 5), 0);
+        Check.same("bus 0 is live", x.bus(0, 5), 1);
+        x.trip(0);
+        Check.same("bus 2: no frequency", x.bus(2, 0), 0);
+        Check.same("bus 2: not live", x.bus(2, 5), 0);
+        x.tick();
+        Check.same("none after a tick", x.bus(0, 0), 0);
+        Check.same("nor phase", x.bus(0, 1), 0);
+    }
+
+    private static void wrongOnes() {
+        ShipPower x = new ShipPower();
+        Check.refused("bus -1", IndexOutOfBoundsException.class, () -> x.bus(-1, 0));
+        Check.refused("bus 3", IndexOutOfBoundsException.class, () -> x.bus(3, 0));
+        Check.refused("what -1", IndexOutOfBoundsException.class, () -> x.bus(0, -1));
+        Check.refused("what 6", IndexOutOfBoundsException.class, () -> x.bus(0, 6));
+        Check.refused("far off", IndexOutOfBoundsException.class, () -> x.bus(Integer.MAX_VALUE, Integer.MIN_VALUE));
+    }
+}

@@ -1,0 +1,82 @@
+/** Promise 18 and step 12: events, all kinds of them, the last 32. */
+public final class EventTest {
+    public static void main(String[] args) {
+        wrongOnes();
+        lastOnes();
+        lifeOfASet();
+        retriesAreNone();
+        Check.end("EventTest");
+    }
+
+    private static void bad(ShipPower x, int k, int what) {
+        Check.refused("event(" + k + ", " + what + ")", IndexOutOfBoundsException.class, () -> x.event(k, what));
+    }
+
+    private static void wrongOnes() {
+        ShipPower x = new ShipPower();
+        bad(x, 0, 0);
+        x.start(3);
+        Check.same("its tick", x.event(0, 0), 0);
+        Check.same("what it was", x.event(0, 1), 5);
+        Check.same("whose", x.event(0, 2), 3);
+        bad(x, 1, 0);
+        bad(x, -1, 0);
+        bad(x, 0, -1);
+        bad(x, 0, 3);
+        bad(x, Integer.MIN_VALUE, 0);
+        bad(x, Integer.MAX_VALUE, 0);
+    }
+
+    private static void lastOnes() {
+        ShipPower x = Scene.running(0);
+        int before = x.count(5);
+        for (int i = 0; i < 40; i++) {
+            Scene.asked(x, 0, 5, 1, 10);
+        }
+        Check.same("all are counted", x.count(5), before + 40);
+        for (int k = 0; k < 32; k++) {
+            Check.same("event " + k, Scene.happened(x, k), 300000 + 700 + 39 - k);
+        }
+        bad(x, 32, 0);
+    }
+
+    private static void lifeOfASet() {
+        ShipPower x = Scene.with(0, 1);
+        x.start(0);
+        x.start(1);
+        Scene.run(x, 30);
+        int[] due = {
+            300000 + 1202, // the ladder, a main bus being live
+            300000 + 201, // ON
+            300000 + 200,
+            300000 + 101, // IDLE
+            300000 + 100,
+            200000 + 1201, // the ladder, in the dark
+            501, // STARTING
+            500,
+        };
+        Check.same("so many", x.count(5), due.length);
+        for (int k = 0; k < due.length; k++) {
+            Check.same("event " + k, Scene.happened(x, k), due[k]);
+        }
+        // Looks in ticks 40, 60, .. 220.
+        Scene.run(x, 190);
+        Check.same("UNLOADING", Scene.happened(x, 0), 220 * 10000 + 601);
+        Check.same("the ladder's end", Scene.happened(x, 1), 90 * 10000 + 1200);
+        Scene.run(x, 19);
+        Check.same("COOLING", Scene.happened(x, 0), 239 * 10000 + 301);
+        int events = x.count(5);
+        Scene.run(x, 100);
+        Check.same("OFF is none", x.count(5), events);
+        Check.same("though it is", Scene.state(x, 1), Scene.OFF);
+    }
+
+    private static void retriesAreNone() {
+        ShipPower x = Scene.with();
+        x.fail(0, Scene.NO_START);
+        x.start(0);
+        Scene.run(x, 90);
+        Check.same("STARTING once", Scene.kept(x, 5, 0), 1);
+        Check.same("BLOCKED", Scene.happened(x, 0), 90 * 10000 + 400);
+    }
+}

@@ -1,0 +1,277 @@
+/** Steps 8 to 10: consumers that wait, sets that are called and sent away. */
+public final class ManagerTest {
+    public static void main(String[] args) {
+        lightOnesWait();
+        heavyOnesWait();
+        demandAsItIsByThen();
+        callsByNeed();
+        callsForHeavyOnes();
+        callsOnlyWhatItCan();
+        callsForADeadGroup();
+        callsByGroups();
+        calmLooks();
+        calmLooksAreBrokenOff();
+        calmNeedsAnother();
+        calmIsKeptForTheLead();
+        lastInOrderGoes();
+        nodeDeadStays();
+        nodeDeadCounts();
+        unloadingSticks();
+        Check.end("ManagerTest");
+    }
+
+    private static void lightOnesWait() {
+        ShipPower x = Scene.with(0);
+        int light = Scene.asked(x, 0, 0, 199, 60);
+        int elsewhere = Scene.asked(x, 1, 0, 10, 10);
+        x.tie(false);
+        x.start(0);
+        Scene.run(x, 29);
+        Check.same("waits", x.look(light, 0), Scene.WAITING);
+        Scene.run(x, 1);
+        Check.same("connected once it is live", x.look(light, 0), Scene.CONNECTED);
+        Check.same("the event", Scene.kept(x, 7, light), 1);
+        Check.same("the other side is dead", x.look(elsewhere, 0), Scene.WAITING);
+    }
+
+    private static void heavyOnesWait() {
+        ShipPower x = Scene.with(0);
+        int over = Scene.asked(x, 0, 0, 200, 51);
+        int just = Scene.asked(x, 0, 0, 200, 50);
+        x.start(0);
+        Scene.run(x, 30);
+        Check.same("1020 of 1000", x.look(over, 0), Scene.WAITING);
+        Check.same("1000 of 1000", x.look(just, 0), Scene.CONNECTED);
+        Scene.run(x, 100);
+        Check.same("800 left: waits", x.look(over, 0), Scene.WAITING);
+        Scene.asked(x, 0, 0, 1, 10);
+        x.ask(just, false);
+        x.ask(over, false);
+        int next = x.consumer(0, 0, 333, 30);
+        Check.same("999 of 999", x.ask(next, true), Scene.CONNECTED);
+    }
+
+    private static void demandAsItIsByThen() {
+        ShipPower x = Scene.with(0);
+        int first = Scene.asked(x, 0, 0, 400, 10);
+        int second = Scene.asked(x, 1, 0, 700, 10);
+        int third = Scene.asked(x, 2, 0, 600, 10);
+        int fourth = Scene.asked(x, 2, 0, 200, 10);
+        x.start(0);
+        Scene.run(x, 30);
+        Check.same("first", x.look(first, 0), Scene.CONNECTED);
+        Check.same("too much", x.look(second, 0), Scene.WAITING);
+        Check.same("just so", x.look(third, 0), Scene.CONNECTED);
+        Check.same("nothing left", x.look(fourth, 0), Scene.WAITING);
+        x.ask(first, false);
+        Scene.run(x, 1);
+        Check.same("what fits of the next", x.look(fourth, 0), Scene.CONNECTED);
+        Check.same("second waits", x.look(second, 0), Scene.WAITING);
+    }
+
+    private static void callsByNeed() {
+        ShipPower x = Scene.running(0);
+        x.fail(2, 0);
+        x.fail(3, 0);
+        Scene.asked(x, 0, 5, 701, 10);
+        Scene.run(x, 9);
+        Check.same("looks only each 20th tick", Scene.state(x, 2), Scene.OFF);
+        Scene.run(x, 1);
+        Check.same("tick 40", Scene.state(x, 2), Scene.STARTING);
+        Check.same("30 left", x.set(2, 6), 30);
+        Check.same("the event", Scene.happened(x, 0), 400000 + 502);
+        Scene.run(x, 60);
+        Check.same("one is enough", Scene.state(x, 3), Scene.OFF);
+    }
+
+    private static void callsForHeavyOnes() {
+        ShipPower x = Scene.running(0);
+        x.fail(1, 0);
+        x.fail(2, 0);
+        Scene.asked(x, 0, 5, 500, 21);
+        Scene.run(x, 9);
+        Check.same("not yet", Scene.state(x, 1), Scene.OFF);
+        Scene.run(x, 1);
+        Check.same("1050 and 300", Scene.state(x, 1), Scene.STARTING);
+        Scene.run(x, 20);
+        Check.same("2000 will do", Scene.state(x, 2), Scene.OFF);
+        Scene.asked(x, 1, 5, 500, 14);
+        Scene.run(x, 20);
+        Check.same("connected, it needs 700 more", Scene.state(x, 2), Scene.STARTING);
+
+        ShipPower light = shoreAtBus0(2, 3);
+        Scene.asked(light, 1, 5, 199, 60);
+        light.start(2);
+        Scene.run(light, 20);
+        Check.same("light ones that wait are no need", Scene.state(light, 3), Scene.OFF);
+
+        ShipPower heavy = shoreAtBus0(2, 3);
+        Scene.asked(heavy, 1, 5, 200, 36);
+        heavy.start(2);
+        Scene.run(heavy, 20);
+        Check.same("heavy ones are", Scene.state(heavy, 3), Scene.STARTING);
+    }
+
+    /** Bus 0 is live by the shore, and bus 1 dead, with no blackout. */
+    private static ShipPower shoreAtBus0(int... sets) {
+        ShipPower x = Scene.with(sets);
+        x.tie(false);
+        x.shore(true, 60000);
+        x.takeShore();
+        return x;
+    }
+
+    private static void callsOnlyWhatItCan() {
+        ShipPower x = Scene.running(0);
+        x.mode(3);
+        Scene.asked(x, 0, 5, 10, 10);
+        x.fail(1, Scene.NODE_DEAD);
+        Scene.run(x, 100);
+        Check.same("NODE DEAD", Scene.state(x, 1), Scene.OFF);
+        x.fail(3, Scene.NO_START);
+        Scene.run(x, 20);
+        Check.same("3 is called", Scene.state(x, 3), Scene.STARTING);
+        Scene.run(x, 100);
+        Check.same("3 is BLOCKED", Scene.state(x, 3), Scene.BLOCKED);
+        x.fail(2, 0);
+        Scene.run(x, 20);
+        Check.same("then 2", Scene.state(x, 2), Scene.STARTING);
+    }
+
+    private static void callsForADeadGroup() {
+        ShipPower x = shoreAtBus0(2);
+        Scene.run(x, 19);
+        Check.same("bus 1 waits for the look", Scene.state(x, 2), Scene.OFF);
+        Scene.run(x, 1);
+        Check.same("live or not", Scene.state(x, 2), Scene.STARTING);
+        Check.same("it is no blackout", x.count(1), 0);
+    }
+
+    private static void callsByGroups() {
+        ShipPower x = Scene.with(0, 2);
+        x.tie(false);
+        x.start(0);
+        x.start(2);
+        Scene.run(x, 30);
+        x.fail(1, 0);
+        x.fail(3, 0);
+        Scene.asked(x, 1, 5, 750, 10);
+        Scene.run(x, 10);
+        Check.same("one more for bus 1, of its own sets", Scene.state(x, 3), Scene.STARTING);
+        Check.same("bus 0 has enough", Scene.state(x, 1), Scene.OFF);
+    }
+
+    private static void calmLooks() {
+        ShipPower x = Scene.running(0, 1);
+        Scene.run(x, 189);
+        Check.same("nine looks by tick 219", Scene.state(x, 1), Scene.ON);
+        Scene.run(x, 1);
+        Check.same("the tenth", Scene.state(x, 1), Scene.UNLOADING);
+        Check.same("it begins in that tick", x.set(1, 5), 950);
+        Check.same("the event", Scene.happened(x, 0), 220 * 10000 + 601);
+        Scene.run(x, 18);
+        Check.same("tick 238", x.set(1, 5), 50);
+        Scene.run(x, 1);
+        Check.same("tick 239", Scene.state(x, 1), Scene.COOLING);
+        Check.same("100 left", x.set(1, 6), 100);
+        Check.same("weight", x.set(1, 5), 0);
+        Check.same("its breaker", x.count(6), 193);
+        Scene.run(x, 1000);
+        Check.same("the last one stays", Scene.state(x, 0), Scene.ON);
+    }
+
+    /** Coming less the rating is 1000: need 1000 is calm, 1001 is not. */
+    private static void calmLooksAreBrokenOff() {
+        ShipPower x = Scene.running(0, 1);
+        x.mode(3);
+        Scene.run(x, 100);
+        int one = Scene.asked(x, 0, 5, 1, 10);
+        Scene.run(x, 20);
+        x.ask(one, false);
+        Scene.run(x, 189);
+        Check.same("tick 339: nine looks anew", Scene.state(x, 1), Scene.ON);
+        Scene.run(x, 1);
+        Check.same("looks 160 .. 340 are ten", Scene.state(x, 1), Scene.UNLOADING);
+
+        ShipPower y = Scene.running(0, 1);
+        y.mode(3);
+        Scene.asked(y, 0, 5, 1, 10);
+        Scene.run(y, 600);
+        Check.same("never calm", Scene.state(y, 1), Scene.ON);
+    }
+
+    /** Set 1 is IDLE for good: it is coming, but not ON. */
+    private static void calmNeedsAnother() {
+        ShipPower x = Scene.running(0);
+        x.start(1);
+        Scene.run(x, 500);
+        Check.same("1 is IDLE", Scene.state(x, 1), Scene.IDLE);
+        Check.same("0 stays", Scene.state(x, 0), Scene.ON);
+    }
+
+    /** Five looks of bus 1 as a lead, three of bus 0 while the tie is closed, then five of bus 1 again. */
+    private static void calmIsKeptForTheLead() {
+        ShipPower x = Scene.with(2, 3);
+        x.tie(false);
+        x.start(2);
+        x.start(3);
+        Scene.run(x, 125);
+        x.tie(true);
+        Scene.run(x, 60);
+        Check.same("one group", x.bus(1, 2), 0);
+        x.tie(false);
+        Scene.run(x, 94);
+        Check.same("tick 279", Scene.state(x, 3), Scene.ON);
+        Scene.run(x, 1);
+        Check.same("tick 280", Scene.state(x, 3), Scene.UNLOADING);
+    }
+
+    private static void lastInOrderGoes() {
+        ShipPower x = Scene.running(0, 1, 2);
+        x.order(2 | 1 << 2 | 3 << 4 | 0 << 6);
+        Scene.run(x, 190);
+        Check.same("0 is the last", Scene.state(x, 0), Scene.UNLOADING);
+        Check.same("1 is not", Scene.state(x, 1), Scene.ON);
+        Scene.run(x, 200);
+        Check.same("then 1", Scene.state(x, 1), Scene.UNLOADING);
+        Check.same("ten looks later", Scene.happened(x, 0), 420 * 10000 + 601);
+    }
+
+    private static void nodeDeadStays() {
+        ShipPower x = Scene.running(0, 1, 2);
+        x.fail(2, Scene.NODE_DEAD);
+        Scene.run(x, 190);
+        Check.same("2 stays", Scene.state(x, 2), Scene.ON);
+        Check.same("1 goes", Scene.state(x, 1), Scene.UNLOADING);
+        Scene.run(x, 200);
+        Check.same("then 0, for 2 is ON", Scene.state(x, 0), Scene.UNLOADING);
+        Scene.run(x, 1000);
+        Check.same("2 alone", x.count(6), 192 | 4);
+    }
+
+    /** A NODE DEAD set that is STARTING or IDLE is coming all the same. */
+    private static void nodeDeadCounts() {
+        ShipPower x = Scene.running(0);
+        x.start(1);
+        x.mode(2);
+        Scene.asked(x, 0, 5, 500, 10);
+        x.fail(2, 0);
+        Scene.run(x, 100);
+        Check.same("1 is IDLE", Scene.state(x, 1), Scene.IDLE);
+        Check.same("2 is not called", Scene.state(x, 2), Scene.OFF);
+    }
+
+    private static void unloadingSticks() {
+        ShipPower x = Scene.running(0, 1);
+        Scene.run(x, 190);
+        x.stick(1, true);
+        Scene.run(x, 25);
+        Check.same("UNLOADING", Scene.state(x, 1), Scene.UNLOADING);
+        Check.same("weight 0", x.set(1, 5), 0);
+        Check.same("ticks 239 .. 245", x.count(8), 7);
+        Check.same("it counts as capacity", x.bus(0, 4), 2000);
+        x.stick(1, false);
+        Scene.run(x, 1);
+        Check.same("COOLING", Scene.state(x, 1), Scene.COOLING);
+    }
+}

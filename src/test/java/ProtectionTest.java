@@ -1,0 +1,240 @@
+/** Step 6: heat, the watch, low frequency. */
+public final class ProtectionTest {
+    public static void main(String[] args) {
+        heat();
+        heatFalls();
+        heatTrips();
+        heatWhileItSticks();
+        watchEdge();
+        watchIsBrokenOff();
+        watchNeedsThree();
+        watchWhileItSticks();
+        watchIsNotOfTheShore();
+        lowFrequency();
+        lowFrequencyWhileItSticks();
+        lowIsKeptForTheLead();
+        Check.end("ProtectionTest");
+    }
+
+    private static void load(ShipPower x, int kilowatts) {
+        for (int rest = kilowatts; rest > 0; rest -= 199) {
+            Scene.asked(x, 0, 5, Math.min(rest, 199), 10);
+        }
+    }
+
+    private static void heat() {
+        ShipPower x = Scene.running(0);
+        load(x, 1000);
+        Scene.run(x, 10);
+        Check.same("the rating is not above it", x.set(0, 2), 0);
+        load(x, 7);
+        Scene.run(x, 10);
+        Check.same("seven each tick", x.set(0, 2), 70);
+    }
+
+    private static void heatFalls() {
+        ShipPower x = Scene.running(0);
+        load(x, 1050);
+        Scene.run(x, 1);
+        x.ask(0, false);
+        Check.same("heat", x.set(0, 2), 50);
+        Scene.run(x, 1);
+        Check.same("20 less", x.set(0, 2), 30);
+        Scene.run(x, 1);
+        Check.same("20 less", x.set(0, 2), 10);
+        Scene.run(x, 1);
+        Check.same("not below 0", x.set(0, 2), 0);
+    }
+
+    /** Of class 5, so that nothing is shed. */
+    private static void heatTrips() {
+        ShipPower x = Scene.running(0);
+        load(x, 1200);
+        Scene.run(x, 99);
+        Check.same("19800", x.set(0, 2), 19800);
+        Scene.run(x, 1);
+        Check.same("20000", Scene.state(x, 0), Scene.COOLING);
+        Check.same("200 left", x.set(0, 6), 200);
+        Check.same("no heat", x.set(0, 2), 0);
+        Check.same("the event", Scene.happened(x, 0), 130 * 10000 + 300);
+        Check.same("breakers", x.count(6), 192);
+    }
+
+    private static void heatWhileItSticks() {
+        ShipPower x = Scene.running(0);
+        load(x, 1200);
+        x.stick(0, true);
+        Scene.run(x, 105);
+        Check.same("ON", Scene.state(x, 0), Scene.ON);
+        Check.same("heat grows on", x.set(0, 2), 21000);
+        Check.same("six times", x.count(8), 6);
+        x.stick(0, false);
+        Scene.run(x, 1);
+        Check.same("then it trips", Scene.state(x, 0), Scene.COOLING);
+    }
+
+    /** Shares D/4, D/2, D/4 where D/3 each is due: D/6 is off by 125 with 750, by 126 with 756. */
+    private static void watchEdge() {
+        ShipPower x = Scene.running(0, 1, 2);
+        load(x, 750);
+        x.fail(1, Scene.HIGH);
+        Scene.run(x, 150);
+        Check.same("375 for 250", Scene.load(x, 1), 375);
+        Check.same("rating / 8 is not too much", Scene.state(x, 1), Scene.ON);
+
+        ShipPower y = Scene.running(0, 1, 2);
+        load(y, 756);
+        y.fail(1, Scene.HIGH);
+        Scene.run(y, 99);
+        Check.same("99 ticks", Scene.state(y, 1), Scene.ON);
+        Scene.run(y, 1);
+        Check.same("100 ticks", Scene.state(y, 1), Scene.BLOCKED);
+        Check.same("the event", Scene.happened(y, 0), 130 * 10000 + 401);
+        Check.same("breakers", y.count(6), 192 | 1 | 4);
+        Check.same("no load", Scene.load(y, 1), 0);
+        Check.same("no tries", y.set(1, 7), 0);
+        y.fail(1, 0);
+        Check.same("mended", Scene.state(y, 1), Scene.OFF);
+
+        ShipPower z = Scene.running(0, 1, 2);
+        load(z, 756);
+        z.fail(1, Scene.LOW);
+        Scene.run(z, 100);
+        Check.same("LOW: 84 for 252", Scene.state(z, 1), Scene.BLOCKED);
+    }
+
+    private static void watchIsBrokenOff() {
+        ShipPower x = Scene.running(0, 1, 2);
+        load(x, 756);
+        x.fail(1, Scene.HIGH);
+        Scene.run(x, 60);
+        x.fail(1, 0);
+        Scene.run(x, 1);
+        x.fail(1, Scene.HIGH);
+        Scene.run(x, 99);
+        Check.same("99 ticks anew", Scene.state(x, 1), Scene.ON);
+        Scene.run(x, 1);
+        Check.same("100 ticks", Scene.state(x, 1), Scene.BLOCKED);
+    }
+
+    private static void watchNeedsThree() {
+        ShipPower x = Scene.running(0, 1);
+        load(x, 900);
+        x.fail(1, Scene.HIGH);
+        Scene.run(x, 150);
+        Check.same("600 for 450", Scene.load(x, 1), 600);
+        Check.same("two cannot tell who is wrong", Scene.state(x, 1), Scene.ON);
+    }
+
+    private static void watchWhileItSticks() {
+        ShipPower x = Scene.running(0, 1, 2);
+        load(x, 756);
+        x.fail(1, Scene.HIGH);
+        x.stick(1, true);
+        Scene.run(x, 102);
+        Check.same("ON", Scene.state(x, 1), Scene.ON);
+        Check.same("three times", x.count(8), 3);
+        x.stick(1, false);
+        Scene.run(x, 1);
+        Check.same("BLOCKED", Scene.state(x, 1), Scene.BLOCKED);
+    }
+
+    /** Sets 0 and 1 LOW: 250, 250 and 600 of the shore; it is far off, and so are they. */
+    private static void watchIsNotOfTheShore() {
+        ShipPower x = Scene.running(0, 1);
+        Scene.run(x, 60);
+        x.shore(true, 60370);
+        x.takeShore();
+        x.mode(3);
+        load(x, 550);
+        int waited = 0;
+        while (Scene.state(x, 5) != Scene.ON && waited < 300) {
+            x.tick();
+            waited++;
+        }
+        Check.same("ON", Scene.state(x, 5), Scene.ON);
+        x.fail(0, Scene.LOW);
+        x.fail(1, Scene.LOW);
+        Scene.run(x, 9);
+        Check.same("550 * 600 / 1100", Scene.load(x, 5), 300);
+        Check.same("125 where 211 is due", Scene.load(x, 0), 125);
+        Scene.asked(x, 0, 5, 251, 10);
+        Scene.run(x, 99);
+        Check.same("99 ticks", Scene.state(x, 1), Scene.ON);
+        Scene.run(x, 1);
+        // Of 801 there are 183, with the one left over, and 182, where 308 are due to each.
+        Check.same("0 just passes", Scene.state(x, 0), Scene.ON);
+        Check.same("1 does not", Scene.state(x, 1), Scene.BLOCKED);
+        Check.same("the shore is not looked at", Scene.state(x, 5), Scene.ON);
+    }
+
+    private static ShipPower onShore(int milliHertz) {
+        ShipPower x = Scene.with();
+        x.shore(true, milliHertz);
+        x.takeShore();
+        return x;
+    }
+
+    private static void lowFrequency() {
+        ShipPower x = onShore(56999);
+        Scene.run(x, 19);
+        Check.same("19 ticks", Scene.state(x, 5), Scene.ON);
+        Scene.run(x, 1);
+        Check.same("20 ticks", Scene.state(x, 5), Scene.COOLING);
+        Check.same("200 left", x.set(5, 6), 200);
+
+        ShipPower edge = onShore(57000);
+        Scene.run(edge, 60);
+        Check.same("57000 is not below", Scene.state(edge, 5), Scene.ON);
+
+        ShipPower broken = onShore(56999);
+        Scene.run(broken, 15);
+        broken.shore(true, 57000);
+        Scene.run(broken, 1);
+        broken.shore(true, 56999);
+        Scene.run(broken, 19);
+        Check.same("19 ticks anew", Scene.state(broken, 5), Scene.ON);
+        Scene.run(broken, 1);
+        Check.same("20 ticks", Scene.state(broken, 5), Scene.COOLING);
+    }
+
+    private static void lowFrequencyWhileItSticks() {
+        ShipPower x = onShore(56000);
+        x.tick();
+        x.stick(5, true);
+        Scene.run(x, 21);
+        Check.same("ON", Scene.state(x, 5), Scene.ON);
+        Check.same("ticks 20, 21, 22", x.count(8), 3);
+        x.stick(5, false);
+        Scene.run(x, 1);
+        Check.same("COOLING", Scene.state(x, 5), Scene.COOLING);
+    }
+
+    /** Bus 1 is low for 11 ticks as a lead of its own, for 2 with bus 0 as its lead, and then for 9 again. */
+    private static void lowIsKeptForTheLead() {
+        ShipPower x = onShore(60000);
+        x.fail(2, 0);
+        x.start(2);
+        x.ticks(1);
+        Check.yes("2 comes", x.ticks(1000) < 1000);
+        x.stick(5, true);
+        x.stick(2, true);
+        x.shore(true, 55000);
+        Scene.run(x, 130);
+        Check.same("55000", x.bus(1, 0), 55000);
+        x.tie(false);
+        x.stick(2, false);
+        Scene.run(x, 10);
+        x.shore(false, 0);
+        Scene.run(x, 1);
+        x.tie(true);
+        Scene.run(x, 2);
+        Check.same("one group", x.bus(1, 2), 0);
+        x.tie(false);
+        Scene.run(x, 8);
+        Check.same("19 ticks", Scene.state(x, 2), Scene.ON);
+        Check.same("low still", x.bus(1, 0), 55000 + 21 * 40);
+        Scene.run(x, 1);
+        Check.same("20 ticks", Scene.state(x, 2), Scene.COOLING);
+    }
+}

@@ -1,0 +1,157 @@
+/** Promises 8, 9, 10 and 16: fail, start, trip and set. */
+public final class SetCallsTest {
+    public static void main(String[] args) {
+        fail();
+        failMendsBlocked();
+        start();
+        trip();
+        whatIsTold();
+        wrongOnes();
+        Check.end("SetCallsTest");
+    }
+
+    private static void fail() {
+        ShipPower x = new ShipPower();
+        for (int set = 0; set < 5; set++) {
+            for (int how = 4; how >= 0; how--) {
+                Check.yes("fail(" + set + ", " + how + ")", x.fail(set, how));
+                Check.same("is told", x.set(set, 8), how);
+            }
+        }
+        Check.no("the shore does not fail", x.fail(5, 1));
+        Check.same("nor is it told so", x.set(5, 8), 0);
+        Check.no("set -1", x.fail(-1, 1));
+        Check.no("set 6", x.fail(6, 0));
+        Check.no("failure 5", x.fail(0, 5));
+        Check.no("failure -1", x.fail(0, -1));
+        Check.same("a refused one changes nothing", x.set(0, 8), 0);
+    }
+
+    private static void failMendsBlocked() {
+        ShipPower x = Scene.with();
+        x.fail(1, Scene.NO_START);
+        x.start(1);
+        Scene.run(x, 90);
+        Check.same("blocked", Scene.state(x, 1), Scene.BLOCKED);
+        Check.same("three tries", x.set(1, 7), 3);
+        int events = x.count(5);
+        Check.yes("another failure", x.fail(1, Scene.HIGH));
+        Check.same("is no help", Scene.state(x, 1), Scene.BLOCKED);
+        Check.same("tries stay", x.set(1, 7), 3);
+        Check.no("it cannot be started", x.start(1));
+        x.fail(1, 0);
+        Check.same("none: it is OFF", Scene.state(x, 1), Scene.OFF);
+        Check.same("tries 0", x.set(1, 7), 0);
+        Check.same("no event of that", x.count(5), events);
+        Check.yes("it can be started", x.start(1));
+        x.fail(1, Scene.NO_START);
+        Scene.run(x, 30);
+        x.fail(1, 0);
+        Check.same("tries stay if it is not blocked", x.set(1, 7), 1);
+        Check.same("and so does its state", Scene.state(x, 1), Scene.STARTING);
+        Scene.run(x, 30);
+        Check.same("it comes", Scene.state(x, 1), Scene.ON);
+        Check.same("tries 0 again", x.set(1, 7), 0);
+    }
+
+    private static void start() {
+        ShipPower x = new ShipPower();
+        for (int set = 0; set < 5; set++) {
+            Check.yes("start(" + set + ")", x.start(set));
+            Check.same("is STARTING", Scene.state(x, set), Scene.STARTING);
+            Check.same("with 30 left", x.set(set, 6), 30);
+            Check.same("an event", Scene.happened(x, 0), 500 + set);
+            Check.no("not twice", x.start(set));
+        }
+        Check.same("five events", x.count(5), 5);
+        Check.no("the shore", x.start(5));
+        Check.no("set -1", x.start(-1));
+        Check.no("set 6", x.start(6));
+
+        ShipPower y = Scene.with();
+        Check.yes("by hand, also with NODE DEAD", y.start(3));
+        Scene.run(y, 30);
+        Check.same("IDLE, for it closes nothing", Scene.state(y, 3), Scene.IDLE);
+        Check.no("an IDLE one", y.start(3));
+
+        ShipPower z = Scene.running(0);
+        Check.no("one that is ON", z.start(0));
+        z.trip(0);
+        Check.no("one that is COOLING", z.start(0));
+    }
+
+    private static void trip() {
+        ShipPower x = Scene.running(0, 1);
+        Scene.asked(x, 0, 5, 100, 10);
+        Scene.run(x, 1);
+        Check.yes("trips", x.trip(1));
+        Check.same("is COOLING", Scene.state(x, 1), Scene.COOLING);
+        Check.same("with 200 left", x.set(1, 6), 200);
+        Check.same("load", Scene.load(x, 1), 0);
+        Check.same("weight", x.set(1, 5), 0);
+        Check.same("the breaker is open", x.count(6), Scene.TIE_AND_FEEDER | 1);
+        Check.same("an event", Scene.happened(x, 0), 310000 + 301);
+        Check.no("not twice", x.trip(1));
+        Check.no("one that is OFF", x.trip(3));
+        Check.no("set -1", x.trip(-1));
+        Check.no("set 6", x.trip(6));
+        x.stick(0, true);
+        Check.no("its breaker sticks", x.trip(0));
+        Check.same("it stays ON", Scene.state(x, 0), Scene.ON);
+        Check.same("that is counted", x.count(8), 1);
+        x.stick(1, true);
+        Check.no("one that is not at its bus", x.trip(1));
+        Check.same("is not counted", x.count(8), 1);
+        Scene.run(x, 199);
+        Check.same("one tick left", x.set(1, 6), 1);
+        Scene.run(x, 1);
+        Check.same("OFF after 200", Scene.state(x, 1), Scene.OFF);
+
+        ShipPower y = Scene.with();
+        y.shore(true, 60000);
+        y.takeShore();
+        Check.no("the shore while it is IDLE", y.trip(5));
+        y.tick();
+        Check.yes("the shore", y.trip(5));
+        Check.same("bus 0 is dead", y.bus(0, 5), 0);
+    }
+
+    private static void whatIsTold() {
+        ShipPower x = Scene.running(0);
+        kilowatts(x, 1100);
+        Scene.run(x, 1);
+        Check.same("load", x.set(0, 1), 1100);
+        Check.same("heat", x.set(0, 2), 100);
+        Check.same("no speed if it is not IDLE", x.set(0, 3), 0);
+        Check.same("nor phase", x.set(0, 4), 0);
+        Check.same("weight", x.set(0, 5), 1000);
+        Check.same("no ticks left", x.set(0, 6), 0);
+        x.trip(0);
+        Check.same("no heat once it left", x.set(0, 2), 0);
+        Check.same("ticks left", x.set(0, 6), 200);
+
+        ShipPower y = Scene.with();
+        y.start(0);
+        Scene.run(y, 31);
+        Check.same("IDLE: no load", y.set(0, 1), 0);
+        Check.same("IDLE: speed", y.set(0, 3), 59020);
+        Check.same("IDLE: phase", y.set(0, 4), 171180);
+        Check.same("IDLE: no weight", y.set(0, 5), 0);
+        Check.same("IDLE: no ticks left", y.set(0, 6), 0);
+    }
+
+    private static void kilowatts(ShipPower x, int all) {
+        for (int rest = all; rest > 0; rest -= 100) {
+            Scene.asked(x, 0, 5, Math.min(rest, 100), 10);
+        }
+    }
+
+    private static void wrongOnes() {
+        ShipPower x = new ShipPower();
+        Check.refused("set -1", IndexOutOfBoundsException.class, () -> x.set(-1, 0));
+        Check.refused("set 6", IndexOutOfBoundsException.class, () -> x.set(6, 0));
+        Check.refused("what -1", IndexOutOfBoundsException.class, () -> x.set(0, -1));
+        Check.refused("what 9", IndexOutOfBoundsException.class, () -> x.set(0, 9));
+        Check.refused("far off", IndexOutOfBoundsException.class, () -> x.set(Integer.MIN_VALUE, Integer.MAX_VALUE));
+    }
+}

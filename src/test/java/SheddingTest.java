@@ -1,0 +1,140 @@
+/** Step 7: classes that are shed. */
+public final class SheddingTest {
+    public static void main(String[] args) {
+        byFrequency();
+        frequencyEdge();
+        byHeat();
+        heatEdge();
+        noConsumerIsNoShedding();
+        groups();
+        onlyConnectedOnes();
+        Check.end("SheddingTest");
+    }
+
+    private static ShipPower onShore(int milliHertz) {
+        ShipPower x = Scene.with();
+        x.shore(true, milliHertz);
+        x.takeShore();
+        x.tick();
+        return x;
+    }
+
+    private static void byFrequency() {
+        ShipPower x = onShore(58000);
+        int c3 = Scene.asked(x, 0, 3, 10, 10);
+        int c1 = Scene.asked(x, 1, 1, 10, 10);
+        int c1too = Scene.asked(x, 2, 1, 10, 10);
+        int c5 = Scene.asked(x, 0, 5, 10, 10);
+        Scene.run(x, 1);
+        Check.same("class 1", x.look(c1, 0), Scene.SHED);
+        Check.same("class 1, another bus", x.look(c1too, 0), Scene.SHED);
+        Check.same("class 3 not yet", x.look(c3, 0), Scene.CONNECTED);
+        Check.same("two are shed", x.count(4), 2);
+        Check.same("the later event", Scene.happened(x, 0), 20000 + 800 + c1too);
+        Check.same("the earlier event", Scene.happened(x, 1), 20000 + 800 + c1);
+        Scene.run(x, 19);
+        Check.same("19 ticks later", x.look(c3, 0), Scene.CONNECTED);
+        Scene.run(x, 1);
+        Check.same("20 ticks later", x.look(c3, 0), Scene.SHED);
+        Check.same("three", x.count(4), 3);
+        Scene.run(x, 60);
+        Check.same("class 5 never", x.look(c5, 0), Scene.CONNECTED);
+        Check.same("three still", x.count(4), 3);
+    }
+
+    private static void frequencyEdge() {
+        ShipPower x = onShore(58500);
+        int one = Scene.asked(x, 0, 0, 10, 10);
+        Scene.run(x, 30);
+        Check.same("58500 is not below", x.look(one, 0), Scene.CONNECTED);
+        x.shore(true, 58499);
+        Scene.run(x, 1);
+        Check.same("58499 is", x.look(one, 0), Scene.SHED);
+    }
+
+    /** 1100 on 1000: 100 each tick, 5000 in the fiftieth. */
+    private static void byHeat() {
+        ShipPower x = Scene.running(0);
+        int[] all = new int[11];
+        for (int i = 0; i < 11; i++) {
+            all[i] = Scene.asked(x, 0, i == 4 ? 4 : 5, 100, 10);
+        }
+        Scene.run(x, 49);
+        Check.same("4900", x.set(0, 2), 4900);
+        Check.same("not yet", x.look(all[4], 0), Scene.CONNECTED);
+        Scene.run(x, 1);
+        Check.same("5000", x.look(all[4], 0), Scene.SHED);
+        Check.same("one", x.count(4), 1);
+        Scene.run(x, 1);
+        Check.same("it cools from then on", x.set(0, 2), 4980);
+    }
+
+    private static void heatEdge() {
+        ShipPower x = Scene.running(0);
+        for (int i = 0; i < 11; i++) {
+            Scene.asked(x, 0, 5, 100, 10);
+        }
+        Scene.run(x, 51);
+        x.ask(0, false);
+        x.ask(1, false);
+        int late = Scene.asked(x, 0, 0, 10, 10);
+        Scene.run(x, 1);
+        Check.same("5080 still", x.set(0, 2), 5080);
+        Check.same("shed at once, nothing having been shed", x.look(late, 0), Scene.SHED);
+        x.ask(late, true);
+        Scene.run(x, 20);
+        Check.same("20 ticks later it is cool", x.look(late, 0), Scene.CONNECTED);
+    }
+
+    private static void noConsumerIsNoShedding() {
+        ShipPower x = onShore(58000);
+        int five = Scene.asked(x, 0, 5, 10, 10);
+        Scene.run(x, 7);
+        int zero = Scene.asked(x, 0, 0, 10, 10);
+        Scene.run(x, 1);
+        Check.same("there was none ahead of it", x.look(zero, 0), Scene.SHED);
+        Check.same("class 5 stays", x.look(five, 0), Scene.CONNECTED);
+    }
+
+    /** Both sides are low: the latest shedding in any group counts. */
+    private static void groups() {
+        ShipPower x = Scene.with(2);
+        x.tie(false);
+        x.start(2);
+        Scene.run(x, 30);
+        for (int i = 0; i < 11; i++) {
+            Scene.asked(x, 1, 5, 100, 10);
+        }
+        Scene.run(x, 51);
+        Check.same("bus 1 is hot", x.set(2, 2), 5100);
+        x.shore(true, 58000);
+        x.takeShore();
+        int at0 = Scene.asked(x, 0, 4, 10, 10);
+        int at1 = Scene.asked(x, 1, 0, 10, 10);
+        Scene.run(x, 1);
+        Check.same("shed at bus 1", x.look(at1, 0), Scene.SHED);
+        Check.same("bus 0 is live by now", x.look(at0, 0), Scene.CONNECTED);
+        x.ask(at1, true);
+        Scene.run(x, 19);
+        Check.same("bus 0 is low, but has to wait", x.look(at0, 0), Scene.CONNECTED);
+        Scene.run(x, 1);
+        Check.same("20 ticks: the first group", x.look(at0, 0), Scene.SHED);
+        Check.same("so not the second", x.look(at1, 0), Scene.CONNECTED);
+        Scene.run(x, 19);
+        Check.same("nor 19 later", x.look(at1, 0), Scene.CONNECTED);
+        Scene.run(x, 1);
+        Check.same("but 20 later", x.look(at1, 0), Scene.SHED);
+        Check.same("three times", x.count(4), 3);
+    }
+
+    private static void onlyConnectedOnes() {
+        ShipPower x = onShore(58000);
+        int off = x.consumer(0, 0, 10, 10);
+        int waits = Scene.asked(x, 0, 1, 800, 10);
+        int on = Scene.asked(x, 0, 2, 10, 10);
+        Scene.run(x, 1);
+        Check.same("OFF", x.look(off, 0), 0);
+        Check.same("WAITING", x.look(waits, 0), Scene.WAITING);
+        Check.same("CONNECTED, so the least class", x.look(on, 0), Scene.SHED);
+    }
+}

@@ -1,0 +1,194 @@
+/** Promises 12 and 13: shore and takeShore; sets in PARALLEL with the shore (step 10). */
+public final class ShoreTest {
+    public static void main(String[] args) {
+        shore();
+        takeShore();
+        shoreGoes();
+        shoreGoesWhileItSticks();
+        speedIsWhatWasTold();
+        closesInStepOnly();
+        parallel();
+        parallelWithNodeDead();
+        Check.end("ShoreTest");
+    }
+
+    private static ShipPower onShore(int milliHertz) {
+        ShipPower x = Scene.with();
+        x.shore(true, milliHertz);
+        x.takeShore();
+        x.tick();
+        return x;
+    }
+
+    private static void shore() {
+        ShipPower x = new ShipPower();
+        Check.yes("least", x.shore(true, 55000));
+        Check.yes("most", x.shore(true, 65000));
+        Check.no("too little", x.shore(true, 54999));
+        Check.no("too much", x.shore(true, 65001));
+        Check.no("below 0", x.shore(true, -60000));
+        Check.yes("it is there as it was told last", x.takeShore());
+        Check.same("at that", x.set(5, 3), 65000);
+        Check.yes("gone, whatever else", x.shore(false, -1));
+        Check.yes("gone again", x.shore(false, Integer.MAX_VALUE));
+        Check.no("a refused one brings none", x.shore(true, 0));
+        Check.no("so it cannot be taken", x.takeShore());
+    }
+
+    private static void takeShore() {
+        ShipPower x = new ShipPower();
+        Check.no("none there", x.takeShore());
+        x.shore(true, 60000);
+        Check.yes("taken", x.takeShore());
+        Check.same("IDLE", Scene.state(x, 5), Scene.IDLE);
+        Check.same("speed", x.set(5, 3), 60000);
+        Check.same("phase", x.set(5, 4), 0);
+        Check.same("an event", Scene.happened(x, 0), 105);
+        Check.no("IDLE already", x.takeShore());
+        x.tick();
+        Check.same("ON, the bus being dead", Scene.state(x, 5), Scene.ON);
+        Check.no("ON already", x.takeShore());
+        Check.same("capacity", x.bus(0, 4), 600);
+        x.trip(5);
+        Check.no("COOLING", x.takeShore());
+        Scene.run(x, 200);
+        Check.yes("OFF again", x.takeShore());
+    }
+
+    private static void shoreGoes() {
+        ShipPower x = onShore(60000);
+        Scene.asked(x, 0, 5, 700, 10);
+        int events = x.count(5);
+        Check.yes("gone", x.shore(false, 0));
+        Check.same("OFF", Scene.state(x, 5), Scene.OFF);
+        Check.same("its breaker is open", x.count(6), 192);
+        Check.same("no load", Scene.load(x, 5), 0);
+        Check.same("bus 0 is dead", x.bus(0, 0), 0);
+        Check.same("no event of that", x.count(5), events);
+
+        ShipPower idle = new ShipPower();
+        idle.shore(true, 60000);
+        idle.takeShore();
+        idle.shore(false, 0);
+        Check.same("OFF if it was IDLE", Scene.state(idle, 5), Scene.OFF);
+
+        ShipPower cooling = onShore(60000);
+        cooling.trip(5);
+        cooling.shore(false, 0);
+        Check.same("a COOLING one stays", Scene.state(cooling, 5), Scene.COOLING);
+        Check.same("with what is left", cooling.set(5, 6), 200);
+    }
+
+    private static void shoreGoesWhileItSticks() {
+        ShipPower x = onShore(60000);
+        x.stick(5, true);
+        x.shore(false, 0);
+        Check.same("OFF", Scene.state(x, 5), Scene.OFF);
+        Check.same("open all the same", x.count(6), 192);
+        Check.same("it did open", x.count(8), 0);
+    }
+
+    private static void speedIsWhatWasTold() {
+        ShipPower x = Scene.running(0);
+        Scene.run(x, 100);
+        x.shore(true, 60000);
+        x.takeShore();
+        x.tick();
+        Check.same("speed", x.set(5, 3), 60000);
+        Check.same("phase, three rounds", x.set(5, 4), 0);
+        x.shore(true, 61000);
+        Check.same("all stays until a tick", x.set(5, 3), 60000);
+        x.tick();
+        Check.same("at once then", x.set(5, 3), 61000);
+        Check.same("9 * 61000", x.set(5, 4), 9000);
+
+        ShipPower y = onShore(60000);
+        y.shore(true, 60100);
+        Check.same("the bus as it was", y.bus(0, 0), 60000);
+        y.tick();
+        Check.same("by 40", y.bus(0, 0), 60040);
+        Scene.run(y, 2);
+        Check.same("to what was told", y.bus(0, 0), 60100);
+        Scene.asked(y, 0, 5, 150, 10);
+        Scene.run(y, 5);
+        Check.same("whatever the load", y.bus(0, 0), 60100);
+    }
+
+    private static void closesInStepOnly() {
+        ShipPower near = Scene.running(0);
+        Scene.run(near, 100);
+        Check.same("the bus", near.bus(0, 0), 60600);
+        near.shore(true, 60750);
+        near.takeShore();
+        Check.yes("150 apart", near.ticks(200) < 200);
+        Check.same("ON", Scene.state(near, 5), Scene.ON);
+
+        ShipPower far = Scene.running(0);
+        Scene.run(far, 100);
+        far.shore(true, 60751);
+        far.takeShore();
+        Check.same("151 apart", far.ticks(1000), 1000);
+        Check.same("IDLE", Scene.state(far, 5), Scene.IDLE);
+
+        ShipPower below = Scene.running(0);
+        Scene.run(below, 100);
+        below.shore(true, 60449);
+        below.takeShore();
+        Check.same("151 below", below.ticks(1000), 1000);
+    }
+
+    /** In one group for 200 ticks: the main sets are sent away. */
+    private static void parallel() {
+        ShipPower x = Scene.running(0, 2);
+        Scene.run(x, 5);
+        // With reserve 1000 and a demand the manager keeps both of them by itself.
+        x.mode(3);
+        Scene.asked(x, 0, 5, 10, 10);
+        x.shore(true, 60700);
+        x.takeShore();
+        int waited = 0;
+        while (Scene.state(x, 5) != Scene.ON && waited < 600) {
+            x.tick();
+            waited++;
+        }
+        Check.same("ON", Scene.state(x, 5), Scene.ON);
+        Scene.run(x, 198);
+        Check.same("199 ticks", Scene.state(x, 0), Scene.ON);
+        Scene.run(x, 1);
+        Check.same("200 ticks: 0", Scene.state(x, 0), Scene.UNLOADING);
+        Check.same("200 ticks: 2", Scene.state(x, 2), Scene.UNLOADING);
+        Check.same("its weight is whole as yet", x.set(0, 5), 1000);
+        Check.same("the later event", Scene.happened(x, 0) % 10000, 602);
+        Check.same("the earlier one", Scene.happened(x, 1) % 10000, 600);
+        Scene.run(x, 19);
+        Check.same("50 left", x.set(0, 5), 50);
+        Scene.run(x, 1);
+        Check.same("gone", Scene.state(x, 0), Scene.COOLING);
+        Check.same("with 100 left", x.set(2, 6), 100);
+        Check.same("the shore alone", x.bus(0, 4), 600);
+    }
+
+    private static void parallelWithNodeDead() {
+        ShipPower x = onShore(60600);
+        x.fail(0, 0);
+        x.fail(2, 0);
+        x.tie(false);
+        x.start(0);
+        x.start(2);
+        int waited = 0;
+        while (Scene.state(x, 0) != Scene.ON && waited < 1000) {
+            x.tick();
+            waited++;
+        }
+        x.fail(0, Scene.NODE_DEAD);
+        Scene.run(x, 250);
+        Check.same("a NODE DEAD one stays", Scene.state(x, 0), Scene.ON);
+        Check.same("one of another group stays", Scene.state(x, 2), Scene.ON);
+        x.fail(0, 0);
+        Scene.run(x, 148);
+        Check.same("counted anew from 200 on", Scene.state(x, 0), Scene.ON);
+        Scene.run(x, 1);
+        Check.same("399 ticks after it came", Scene.state(x, 0), Scene.UNLOADING);
+        Check.same("the other group's stays", Scene.state(x, 2), Scene.ON);
+    }
+}
