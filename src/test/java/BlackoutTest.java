@@ -5,7 +5,10 @@ public final class BlackoutTest {
         whoIsCalledByOrder();
         whoCannotBeCalled();
         storedAndBroughtBack();
+        firstTwoOfAll();
         emergencyIsNotEnough();
+        emergencyIsNotDark();
+        oneMainBusIsEnough();
         darkIsBrokenOff();
         classesGoOnInTheDark();
         waitingOnesWaitOn();
@@ -54,6 +57,48 @@ public final class BlackoutTest {
         Check.same("one blackout while the ladder is at 1", none.count(1), 1);
         Check.same("at 1", none.count(2), 1);
         Check.same("one event", none.count(5), 1);
+    }
+
+    /** Dark from tick 6 to tick 25; in the look of tick 20 nothing can be called. */
+    private static void firstTwoOfAll() {
+        ShipPower x = Scene.with();
+        x.shore(true, 60000);
+        x.takeShore();
+        Scene.run(x, 5);
+        x.shore(false, 0);
+        Scene.run(x, 15);
+        for (int set = 0; set < 5; set++) {
+            x.fail(set, 0);
+        }
+        Scene.run(x, 4);
+        Check.same("nothing yet", x.count(1), 0);
+        Scene.run(x, 1);
+        lastEvents("first two", x, 251201, 250501, 250500, 250504);
+    }
+
+    /** Set 4 stands by and takes bus 2 in the tick after the trip. */
+    private static void emergencyIsNotDark() {
+        ShipPower x = Scene.running(0);
+        x.fail(4, 0);
+        x.start(4);
+        Scene.run(x, 70);
+        Check.same("the first ladder is done", x.count(2), 0);
+        x.trip(0);
+        Scene.run(x, 60);
+        Check.same("bus 2 is live", x.bus(2, 5), 1);
+        Check.same("no other blackout", x.count(1), 1);
+    }
+
+    private static void oneMainBusIsEnough() {
+        ShipPower x = Scene.with(2);
+        x.tie(false);
+        x.start(2);
+        x.stick(7, true);
+        Scene.run(x, 30);
+        Check.same("bus 1 alone", x.count(6), 128 | 4);
+        Check.same("the ladder is at 2", x.count(2), 2);
+        Scene.run(x, 100);
+        Check.same("one blackout", x.count(1), 1);
     }
 
     private static void storedAndBroughtBack() {

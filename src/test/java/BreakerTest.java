@@ -6,6 +6,7 @@ public final class BreakerTest {
         tieOfDeadSides();
         tieOfOneLiveSide();
         tieOfLiveSides();
+        tieAndEmergency();
         tieThatSticks();
         Check.end("BreakerTest");
     }
@@ -132,6 +133,22 @@ public final class BreakerTest {
         Check.same("150 apart", far.bus(0, 0) - far.bus(1, 0), 150);
         Scene.run(far, 140);
         Check.yes("closed", Scene.isClosed(far, 6));
+    }
+
+    /** Bus 2 lives by set 4, bus 1 by set 2: the tie hands on what bus 1 has. */
+    private static void tieAndEmergency() {
+        ShipPower x = Scene.with(2, 4);
+        x.tie(false);
+        x.start(4);
+        Scene.run(x, 20);
+        x.start(2);
+        Scene.run(x, 40);
+        Check.yes("they differ", x.bus(1, 0) != x.bus(2, 0));
+        int frequency = x.bus(1, 0);
+        x.tie(true);
+        Scene.run(x, 1);
+        Check.same("bus 0 runs with bus 1", x.bus(0, 0), Math.min(60600, frequency + 40));
+        Check.same("bus 2 is apart", x.bus(2, 2), 2);
     }
 
     private static int angle(int a, int b) {

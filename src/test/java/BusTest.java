@@ -4,6 +4,7 @@ public final class BusTest {
         leads();
         wholeGroup();
         deadBus();
+        ratings();
         wrongOnes();
         Check.end("BusTest");
     }
@@ -73,6 +74,19 @@ public final class BusTest {
         x.tick();
         Check.same("none after a tick", x.bus(0, 0), 0);
         Check.same("nor phase", x.bus(0, 1), 0);
+    }
+
+    private static void ratings() {
+        int[] due = {1000, 1000, 1000, 1000, 200};
+        int[] at = {0, 0, 1, 1, 2};
+        for (int set = 0; set < 5; set++) {
+            ShipPower x = Scene.with(set);
+            x.tie(false);
+            x.start(set);
+            Scene.run(x, 30);
+            Check.same("capacity of " + set, x.bus(at[set], 4), due[set]);
+            Check.same("not at another bus", x.bus((at[set] + 1) % 2, 4), 0);
+        }
     }
 
     private static void wrongOnes() {

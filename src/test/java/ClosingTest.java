@@ -9,6 +9,7 @@ public final class ClosingTest {
         emergencyBreakerSticks();
         emergencyGoes();
         emergencyGoesAfterEachOfHundred();
+        emergencyGoesByBus0();
         emergencySticks();
         feedersChange();
         feederSticks();
@@ -130,6 +131,18 @@ public final class ClosingTest {
         Check.same("139: bus 1 a hundred times", Scene.state(x, 4), Scene.COOLING);
         Scene.run(x, 1);
         Check.same("8 closed", x.count(6), 256 | 4);
+    }
+
+    private static void emergencyGoesByBus0() {
+        ShipPower x = Scene.with(0, 4);
+        x.tie(false);
+        x.start(4);
+        Scene.run(x, 5);
+        x.start(0);
+        Scene.run(x, 30 + 98);
+        Check.same("bus 0 99 times", Scene.state(x, 4), Scene.ON);
+        Scene.run(x, 1);
+        Check.same("a hundred times", Scene.state(x, 4), Scene.COOLING);
     }
 
     private static void emergencySticks() {

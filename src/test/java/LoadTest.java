@@ -14,23 +14,17 @@ public final class LoadTest {
         Check.end("LoadTest");
     }
 
-    private static void load(ShipPower x, int kilowatts) {
-        for (int rest = kilowatts; rest > 0; rest -= 199) {
-            Scene.asked(x, 0, 5, Math.min(rest, 199), 10);
-        }
-    }
-
     private static void frequencyByLoad() {
         int[] demands = {0, 1, 500, 777, 1000};
         int[] due = {60600, 60599, 60000, 59668, 59400};
         for (int i = 0; i < demands.length; i++) {
             ShipPower x = Scene.running(0);
-            load(x, demands[i]);
+            Scene.burden(x, demands[i]);
             Scene.run(x, 50);
             Check.same("demand " + demands[i], x.bus(0, 0), due[i]);
         }
         ShipPower two = Scene.running(0, 1);
-        load(two, 777);
+        Scene.burden(two, 777);
         Scene.run(two, 50);
         Check.same("1200 * 777 / 2000 is 466", two.bus(0, 0), 60134);
     }
@@ -47,7 +41,7 @@ public final class LoadTest {
             Check.same("up", x.bus(0, 0), frequency);
             Check.same("phase", x.bus(0, 1), phase);
         }
-        load(x, 90);
+        Scene.burden(x, 90);
         int[] down = {60560, 60520, 60492, 60492};
         for (int due : down) {
             x.tick();
@@ -91,7 +85,7 @@ public final class LoadTest {
 
     private static void evenShares() {
         ShipPower x = Scene.running(0, 1, 2);
-        load(x, 190);
+        Scene.burden(x, 190);
         Scene.run(x, 1);
         loadsAre("the one left over goes to 0", x, 64, 63, 63, 0);
         Scene.asked(x, 1, 5, 1, 10);
@@ -104,7 +98,7 @@ public final class LoadTest {
 
     private static void governors() {
         ShipPower x = Scene.running(0, 1, 2);
-        load(x, 100);
+        Scene.burden(x, 100);
         x.fail(1, Scene.HIGH);
         Scene.run(x, 1);
         loadsAre("1 HIGH", x, 25, 50, 25);
@@ -133,7 +127,7 @@ public final class LoadTest {
     /** Set 1 is sent away in tick 220; its weight is 950 in the loads of tick 221. */
     private static void unloadingShares() {
         ShipPower x = Scene.running(0, 1);
-        load(x, 100);
+        Scene.burden(x, 100);
         Scene.run(x, 190);
         Check.same("UNLOADING", Scene.state(x, 1), Scene.UNLOADING);
         Check.same("its weight", x.set(1, 5), 950);
@@ -158,7 +152,7 @@ public final class LoadTest {
     /** A set that cannot leave, with weight 0, and no other one. */
     private static void allWeightsAre0() {
         ShipPower x = Scene.running(0, 1);
-        load(x, 100);
+        Scene.burden(x, 100);
         Scene.run(x, 190);
         x.stick(1, true);
         Scene.run(x, 30);
@@ -181,7 +175,7 @@ public final class LoadTest {
         x.takeShore();
         Check.yes("the shore comes", x.ticks(300) < 300);
         Check.same("the shore is ON", Scene.state(x, 5), Scene.ON);
-        load(x, 161);
+        Scene.burden(x, 161);
         Scene.run(x, 1);
         Check.same("161 * 1000 / 1600 and one left over", Scene.load(x, 0), 101);
         Check.same("161 * 600 / 1600", Scene.load(x, 5), 60);

@@ -11,8 +11,11 @@ public final class ManagerTest {
         callsByGroups();
         calmLooks();
         calmLooksAreBrokenOff();
+        calmLooksEndWithACall();
         calmNeedsAnother();
         calmIsKeptForTheLead();
+        calmOfALaterLead();
+        emergencyIsNotComing();
         lastInOrderGoes();
         nodeDeadStays();
         nodeDeadCounts();
@@ -198,6 +201,41 @@ public final class ManagerTest {
         Scene.asked(y, 0, 5, 1, 10);
         Scene.run(y, 600);
         Check.same("never calm", Scene.state(y, 1), Scene.ON);
+    }
+
+    /** Looks 40 .. 120 are calm; in tick 140 there is too little, and none can be called; then it is calm again. */
+    private static void calmLooksEndWithACall() {
+        ShipPower x = Scene.running(0, 1);
+        Scene.run(x, 100);
+        int big = Scene.asked(x, 0, 5, 750, 24);
+        Scene.run(x, 10);
+        Check.same("connected: 1800 and 300 of 2000", x.look(big, 0), Scene.CONNECTED);
+        x.ask(big, false);
+        Scene.run(x, 199);
+        Check.same("tick 339", Scene.state(x, 1), Scene.ON);
+        Scene.run(x, 1);
+        Check.same("tick 340", Scene.state(x, 1), Scene.UNLOADING);
+    }
+
+    /** The tie opens in tick 35: bus 1 looks for itself from tick 40 on. */
+    private static void calmOfALaterLead() {
+        ShipPower x = Scene.running(2, 3);
+        Scene.run(x, 5);
+        x.tie(false);
+        Scene.run(x, 184);
+        Check.same("tick 219", Scene.state(x, 3), Scene.ON);
+        Scene.run(x, 1);
+        Check.same("tick 220", Scene.state(x, 3), Scene.UNLOADING);
+    }
+
+    private static void emergencyIsNotComing() {
+        ShipPower x = Scene.running(0);
+        x.start(4);
+        x.fail(1, 0);
+        Scene.asked(x, 0, 5, 750, 10);
+        Scene.run(x, 10);
+        Check.same("4 is STARTING in the group", Scene.state(x, 4), Scene.STARTING);
+        Check.same("1 is called all the same", Scene.state(x, 1), Scene.STARTING);
     }
 
     /** Set 1 is IDLE for good: it is coming, but not ON. */

@@ -41,10 +41,7 @@ public final class ModeAndOrderTest {
         ShipPower x = Scene.running(0);
         x.fail(1, 0);
         x.mode(mode);
-        // By parts of less than 200: heavy ones would wait.
-        for (int rest = demand; rest > 0; rest -= 150) {
-            Scene.asked(x, 0, 5, Math.min(rest, 150), 10);
-        }
+        Scene.burden(x, demand);
         Scene.run(x, 10);
         return Scene.state(x, 1) == Scene.STARTING;
     }

@@ -4,42 +4,42 @@ public final class ProtectionTest {
         heat();
         heatFalls();
         heatTrips();
+        heatJustBelow();
         heatWhileItSticks();
         watchEdge();
         watchIsBrokenOff();
+        watchForgetsWhatLeft();
         watchNeedsThree();
         watchWhileItSticks();
         watchIsNotOfTheShore();
         lowFrequency();
+        lowFrequencyTripsAll();
         lowFrequencyWhileItSticks();
         lowIsKeptForTheLead();
         Check.end("ProtectionTest");
     }
 
-    private static void load(ShipPower x, int kilowatts) {
-        for (int rest = kilowatts; rest > 0; rest -= 199) {
-            Scene.asked(x, 0, 5, Math.min(rest, 199), 10);
-        }
-    }
-
     private static void heat() {
         ShipPower x = Scene.running(0);
-        load(x, 1000);
+        Scene.burden(x, 1000);
         Scene.run(x, 10);
         Check.same("the rating is not above it", x.set(0, 2), 0);
-        load(x, 7);
+        Scene.burden(x, 7);
         Scene.run(x, 10);
         Check.same("seven each tick", x.set(0, 2), 70);
     }
 
     private static void heatFalls() {
         ShipPower x = Scene.running(0);
-        load(x, 1050);
+        Scene.burden(x, 1000);
+        int more = Scene.asked(x, 0, 5, 50, 10);
         Scene.run(x, 1);
-        x.ask(0, false);
+        x.ask(more, false);
         Check.same("heat", x.set(0, 2), 50);
         Scene.run(x, 1);
+        Check.same("just the rating", Scene.load(x, 0), 1000);
         Check.same("20 less", x.set(0, 2), 30);
+        x.ask(0, false);
         Scene.run(x, 1);
         Check.same("20 less", x.set(0, 2), 10);
         Scene.run(x, 1);
@@ -49,7 +49,7 @@ public final class ProtectionTest {
     /** Of class 5, so that nothing is shed. */
     private static void heatTrips() {
         ShipPower x = Scene.running(0);
-        load(x, 1200);
+        Scene.burden(x, 1200);
         Scene.run(x, 99);
         Check.same("19800", x.set(0, 2), 19800);
         Scene.run(x, 1);
@@ -60,9 +60,20 @@ public final class ProtectionTest {
         Check.same("breakers", x.count(6), 192);
     }
 
+    private static void heatJustBelow() {
+        ShipPower x = Scene.running(0);
+        Scene.burden(x, 1199);
+        int one = Scene.asked(x, 0, 5, 1, 10);
+        Scene.run(x, 99);
+        x.ask(one, false);
+        Scene.run(x, 1);
+        Check.same("19999", x.set(0, 2), 19999);
+        Check.same("ON", Scene.state(x, 0), Scene.ON);
+    }
+
     private static void heatWhileItSticks() {
         ShipPower x = Scene.running(0);
-        load(x, 1200);
+        Scene.burden(x, 1200);
         x.stick(0, true);
         Scene.run(x, 105);
         Check.same("ON", Scene.state(x, 0), Scene.ON);
@@ -76,14 +87,14 @@ public final class ProtectionTest {
     /** Shares D/4, D/2, D/4 where D/3 each is due: D/6 is off by 125 with 750, by 126 with 756. */
     private static void watchEdge() {
         ShipPower x = Scene.running(0, 1, 2);
-        load(x, 750);
+        Scene.burden(x, 750);
         x.fail(1, Scene.HIGH);
         Scene.run(x, 150);
         Check.same("375 for 250", Scene.load(x, 1), 375);
         Check.same("rating / 8 is not too much", Scene.state(x, 1), Scene.ON);
 
         ShipPower y = Scene.running(0, 1, 2);
-        load(y, 756);
+        Scene.burden(y, 756);
         y.fail(1, Scene.HIGH);
         Scene.run(y, 99);
         Check.same("99 ticks", Scene.state(y, 1), Scene.ON);
@@ -97,7 +108,7 @@ public final class ProtectionTest {
         Check.same("mended", Scene.state(y, 1), Scene.OFF);
 
         ShipPower z = Scene.running(0, 1, 2);
-        load(z, 756);
+        Scene.burden(z, 756);
         z.fail(1, Scene.LOW);
         Scene.run(z, 100);
         Check.same("LOW: 84 for 252", Scene.state(z, 1), Scene.BLOCKED);
@@ -105,7 +116,7 @@ public final class ProtectionTest {
 
     private static void watchIsBrokenOff() {
         ShipPower x = Scene.running(0, 1, 2);
-        load(x, 756);
+        Scene.burden(x, 756);
         x.fail(1, Scene.HIGH);
         Scene.run(x, 60);
         x.fail(1, 0);
@@ -117,9 +128,28 @@ public final class ProtectionTest {
         Check.same("100 ticks", Scene.state(x, 1), Scene.BLOCKED);
     }
 
+    /** Set 1 is off for 60 ticks, leaves, and comes back as wrong as it was. */
+    private static void watchForgetsWhatLeft() {
+        ShipPower x = Scene.running(0, 1, 2);
+        Scene.burden(x, 756);
+        x.mode(3);
+        Scene.asked(x, 0, 5, 300, 10);
+        x.fail(1, Scene.HIGH);
+        Scene.run(x, 60);
+        x.trip(1);
+        Scene.run(x, 210);
+        Check.same("called again", Scene.state(x, 1), Scene.STARTING);
+        Check.yes("it comes", x.ticks(500) < 500);
+        Check.same("ON", Scene.state(x, 1), Scene.ON);
+        Scene.run(x, 98);
+        Check.same("99 ticks", Scene.state(x, 1), Scene.ON);
+        Scene.run(x, 1);
+        Check.same("100 ticks", Scene.state(x, 1), Scene.BLOCKED);
+    }
+
     private static void watchNeedsThree() {
         ShipPower x = Scene.running(0, 1);
-        load(x, 900);
+        Scene.burden(x, 900);
         x.fail(1, Scene.HIGH);
         Scene.run(x, 150);
         Check.same("600 for 450", Scene.load(x, 1), 600);
@@ -128,7 +158,7 @@ public final class ProtectionTest {
 
     private static void watchWhileItSticks() {
         ShipPower x = Scene.running(0, 1, 2);
-        load(x, 756);
+        Scene.burden(x, 756);
         x.fail(1, Scene.HIGH);
         x.stick(1, true);
         Scene.run(x, 102);
@@ -146,7 +176,7 @@ public final class ProtectionTest {
         x.shore(true, 60370);
         x.takeShore();
         x.mode(3);
-        load(x, 550);
+        Scene.burden(x, 550);
         int waited = 0;
         while (Scene.state(x, 5) != Scene.ON && waited < 300) {
             x.tick();
@@ -168,26 +198,19 @@ public final class ProtectionTest {
         Check.same("the shore is not looked at", Scene.state(x, 5), Scene.ON);
     }
 
-    private static ShipPower onShore(int milliHertz) {
-        ShipPower x = Scene.with();
-        x.shore(true, milliHertz);
-        x.takeShore();
-        return x;
-    }
-
     private static void lowFrequency() {
-        ShipPower x = onShore(56999);
+        ShipPower x = Scene.shoreTaken(56999);
         Scene.run(x, 19);
         Check.same("19 ticks", Scene.state(x, 5), Scene.ON);
         Scene.run(x, 1);
         Check.same("20 ticks", Scene.state(x, 5), Scene.COOLING);
         Check.same("200 left", x.set(5, 6), 200);
 
-        ShipPower edge = onShore(57000);
+        ShipPower edge = Scene.shoreTaken(57000);
         Scene.run(edge, 60);
         Check.same("57000 is not below", Scene.state(edge, 5), Scene.ON);
 
-        ShipPower broken = onShore(56999);
+        ShipPower broken = Scene.shoreTaken(56999);
         Scene.run(broken, 15);
         broken.shore(true, 57000);
         Scene.run(broken, 1);
@@ -198,8 +221,29 @@ public final class ProtectionTest {
         Check.same("20 ticks", Scene.state(broken, 5), Scene.COOLING);
     }
 
+    private static void lowFrequencyTripsAll() {
+        ShipPower x = Scene.shoreTaken(60000);
+        x.fail(0, 0);
+        x.fail(2, 0);
+        x.start(0);
+        x.start(2);
+        x.ticks(1);
+        Check.yes("they come", x.ticks(1000) < 1000);
+        Check.same("all three", x.count(6), 192 | 1 | 4 | 32);
+        // 56960 after 76 ticks.
+        x.shore(true, 55000);
+        Scene.run(x, 94);
+        Check.same("19 ticks", x.count(6), 192 | 1 | 4 | 32);
+        Scene.run(x, 1);
+        Check.same("20 ticks", x.count(6), 192);
+        Check.same("0", Scene.state(x, 0), Scene.COOLING);
+        Check.same("by numbers: 5 is the last", x.event(0, 2), 5);
+        Check.same("2", x.event(1, 2), 2);
+        Check.same("0", x.event(2, 2), 0);
+    }
+
     private static void lowFrequencyWhileItSticks() {
-        ShipPower x = onShore(56000);
+        ShipPower x = Scene.shoreTaken(56000);
         x.tick();
         x.stick(5, true);
         Scene.run(x, 21);
@@ -212,7 +256,7 @@ public final class ProtectionTest {
 
     /** Bus 1 is low for 11 ticks as a lead of its own, for 2 with bus 0 as its lead, and then for 9 again. */
     private static void lowIsKeptForTheLead() {
-        ShipPower x = onShore(60000);
+        ShipPower x = Scene.shoreTaken(60000);
         x.fail(2, 0);
         x.start(2);
         x.ticks(1);

@@ -64,6 +64,27 @@ final class Scene {
         return number;
     }
 
+    /** A demand of bus 0 that is there at once and never shed: in parts below 200, for heavy ones may wait. */
+    static void burden(ShipPower x, int kilowatts) {
+        for (int rest = kilowatts; rest > 0; rest -= 199) {
+            asked(x, 0, 5, Math.min(rest, 199), 10);
+        }
+    }
+
+    /** No set but the shore, which is ON with the next tick. */
+    static ShipPower shoreTaken(int milliHertz) {
+        ShipPower x = with();
+        x.shore(true, milliHertz);
+        x.takeShore();
+        return x;
+    }
+
+    static ShipPower onShore(int milliHertz) {
+        ShipPower x = shoreTaken(milliHertz);
+        x.tick();
+        return x;
+    }
+
     static int state(ShipPower x, int set) {
         return x.set(set, 0);
     }

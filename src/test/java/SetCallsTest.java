@@ -118,7 +118,7 @@ public final class SetCallsTest {
 
     private static void whatIsTold() {
         ShipPower x = Scene.running(0);
-        kilowatts(x, 1100);
+        Scene.burden(x, 1100);
         Scene.run(x, 1);
         Check.same("load", x.set(0, 1), 1100);
         Check.same("heat", x.set(0, 2), 100);
@@ -138,12 +138,6 @@ public final class SetCallsTest {
         Check.same("IDLE: phase", y.set(0, 4), 171180);
         Check.same("IDLE: no weight", y.set(0, 5), 0);
         Check.same("IDLE: no ticks left", y.set(0, 6), 0);
-    }
-
-    private static void kilowatts(ShipPower x, int all) {
-        for (int rest = all; rest > 0; rest -= 100) {
-            Scene.asked(x, 0, 5, Math.min(rest, 100), 10);
-        }
     }
 
     private static void wrongOnes() {

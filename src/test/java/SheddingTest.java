@@ -11,16 +11,8 @@ public final class SheddingTest {
         Check.end("SheddingTest");
     }
 
-    private static ShipPower onShore(int milliHertz) {
-        ShipPower x = Scene.with();
-        x.shore(true, milliHertz);
-        x.takeShore();
-        x.tick();
-        return x;
-    }
-
     private static void byFrequency() {
-        ShipPower x = onShore(58000);
+        ShipPower x = Scene.onShore(58000);
         int c3 = Scene.asked(x, 0, 3, 10, 10);
         int c1 = Scene.asked(x, 1, 1, 10, 10);
         int c1too = Scene.asked(x, 2, 1, 10, 10);
@@ -43,7 +35,7 @@ public final class SheddingTest {
     }
 
     private static void frequencyEdge() {
-        ShipPower x = onShore(58500);
+        ShipPower x = Scene.onShore(58500);
         int one = Scene.asked(x, 0, 0, 10, 10);
         Scene.run(x, 30);
         Check.same("58500 is not below", x.look(one, 0), Scene.CONNECTED);
@@ -61,8 +53,16 @@ public final class SheddingTest {
         }
         Scene.run(x, 49);
         Check.same("4900", x.set(0, 2), 4900);
-        Check.same("not yet", x.look(all[4], 0), Scene.CONNECTED);
+        x.ask(all[5], false);
+        Scene.asked(x, 0, 5, 99, 10);
         Scene.run(x, 1);
+        Check.same("4999", x.set(0, 2), 4999);
+        Check.same("not yet", x.look(all[4], 0), Scene.CONNECTED);
+        Scene.asked(x, 0, 5, 1, 10);
+        x.ask(all[6], false);
+        Scene.asked(x, 0, 5, 1, 10);
+        Scene.run(x, 1);
+        Check.same("cooler with 1001, by one warmer", x.set(0, 2), 5000);
         Check.same("5000", x.look(all[4], 0), Scene.SHED);
         Check.same("one", x.count(4), 1);
         Scene.run(x, 1);
@@ -87,7 +87,7 @@ public final class SheddingTest {
     }
 
     private static void noConsumerIsNoShedding() {
-        ShipPower x = onShore(58000);
+        ShipPower x = Scene.onShore(58000);
         int five = Scene.asked(x, 0, 5, 10, 10);
         Scene.run(x, 7);
         int zero = Scene.asked(x, 0, 0, 10, 10);
@@ -128,7 +128,7 @@ public final class SheddingTest {
     }
 
     private static void onlyConnectedOnes() {
-        ShipPower x = onShore(58000);
+        ShipPower x = Scene.onShore(58000);
         int off = x.consumer(0, 0, 10, 10);
         int waits = Scene.asked(x, 0, 1, 800, 10);
         int on = Scene.asked(x, 0, 2, 10, 10);

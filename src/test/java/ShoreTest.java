@@ -12,14 +12,6 @@ public final class ShoreTest {
         Check.end("ShoreTest");
     }
 
-    private static ShipPower onShore(int milliHertz) {
-        ShipPower x = Scene.with();
-        x.shore(true, milliHertz);
-        x.takeShore();
-        x.tick();
-        return x;
-    }
-
     private static void shore() {
         ShipPower x = new ShipPower();
         Check.yes("least", x.shore(true, 55000));
@@ -56,7 +48,7 @@ public final class ShoreTest {
     }
 
     private static void shoreGoes() {
-        ShipPower x = onShore(60000);
+        ShipPower x = Scene.onShore(60000);
         Scene.asked(x, 0, 5, 700, 10);
         int events = x.count(5);
         Check.yes("gone", x.shore(false, 0));
@@ -66,13 +58,22 @@ public final class ShoreTest {
         Check.same("bus 0 is dead", x.bus(0, 0), 0);
         Check.same("no event of that", x.count(5), events);
 
+        ShipPower hot = Scene.onShore(60000);
+        for (int i = 0; i < 7; i++) {
+            Scene.asked(hot, 0, 5, 100, 10);
+        }
+        Scene.run(hot, 1);
+        Check.same("hot", hot.set(5, 2), 100);
+        hot.shore(false, 0);
+        Check.same("no heat once it left", hot.set(5, 2), 0);
+
         ShipPower idle = new ShipPower();
         idle.shore(true, 60000);
         idle.takeShore();
         idle.shore(false, 0);
         Check.same("OFF if it was IDLE", Scene.state(idle, 5), Scene.OFF);
 
-        ShipPower cooling = onShore(60000);
+        ShipPower cooling = Scene.onShore(60000);
         cooling.trip(5);
         cooling.shore(false, 0);
         Check.same("a COOLING one stays", Scene.state(cooling, 5), Scene.COOLING);
@@ -80,7 +81,7 @@ public final class ShoreTest {
     }
 
     private static void shoreGoesWhileItSticks() {
-        ShipPower x = onShore(60000);
+        ShipPower x = Scene.onShore(60000);
         x.stick(5, true);
         x.shore(false, 0);
         Check.same("OFF", Scene.state(x, 5), Scene.OFF);
@@ -102,7 +103,7 @@ public final class ShoreTest {
         Check.same("at once then", x.set(5, 3), 61000);
         Check.same("9 * 61000", x.set(5, 4), 9000);
 
-        ShipPower y = onShore(60000);
+        ShipPower y = Scene.onShore(60000);
         y.shore(true, 60100);
         Check.same("the bus as it was", y.bus(0, 0), 60000);
         y.tick();
@@ -169,7 +170,7 @@ public final class ShoreTest {
     }
 
     private static void parallelWithNodeDead() {
-        ShipPower x = onShore(60600);
+        ShipPower x = Scene.onShore(60600);
         x.fail(0, 0);
         x.fail(2, 0);
         x.tie(false);

@@ -5,7 +5,10 @@ public final class StartingTest {
         noStart();
         noStartMended();
         idleAtDeadBus();
-        idleAtLiveBus();
+        for (int delay = 60; delay < 160; delay++) {
+            idleAtLiveBus(delay);
+        }
+        phaseBeginsAnew();
         emergencyTurnsAt60000();
         Check.end("StartingTest");
     }
@@ -73,34 +76,58 @@ public final class StartingTest {
         Check.same("60000 at last", speed, 60000);
     }
 
-    /** It follows the frequency of the tick before, and closes once they are in step. */
-    private static void idleAtLiveBus() {
+    /** It follows the bus and closes once they are in step: when, is worked out here tick by tick. */
+    private static void idleAtLiveBus(int delay) {
         ShipPower x = Scene.running(0);
-        Scene.run(x, 60);
+        Scene.run(x, delay);
+        Check.same("the bus runs at", x.bus(0, 0), 60600);
         x.fail(1, 0);
         x.start(1);
-        // Nearly round the circle ahead of the ticks that are looked at one by one.
-        Scene.run(x, 30 + 80);
-        int speed = x.set(1, 3);
-        int phase = x.set(1, 4);
-        int waited = 0;
-        boolean inStep = false;
-        while (!inStep && waited < 90) {
-            int frequency = x.bus(0, 0);
-            int busPhase = x.bus(0, 1);
-            Check.same("speed", x.set(1, 3), speed);
-            Check.same("phase", x.set(1, 4), phase);
-            speed += Math.max(-20, Math.min(20, frequency + 100 - speed));
-            phase = (phase + 9 * speed) % 180000;
-            int way = Math.abs(phase - busPhase);
-            inStep = Math.abs(speed - frequency) <= 150 && Math.min(way, 180000 - way) <= 5000;
-            x.tick();
-            waited++;
-            Check.same("ON just if in step", Scene.state(x, 1), inStep ? Scene.ON : Scene.IDLE);
+        int due = ticksUntilInStep(x.bus(0, 1));
+        Scene.run(x, 31);
+        if (due > 31) {
+            Check.same("speed after a tick of IDLE", x.set(1, 3), 59020);
+            Check.same("phase after a tick of IDLE", x.set(1, 4), 9 * 59020 % 180000);
+            Check.same("ticks from start to ON, delay " + delay, 31 + x.ticks(900), due);
         }
-        Check.yes("not at once, but some time", waited > 10 && inStep);
+        Check.same("ON", Scene.state(x, 1), Scene.ON);
         Check.same("weight", x.set(1, 5), 1000);
         Check.same("the bus keeps its own", x.bus(0, 0), 60600);
+    }
+
+    private static int ticksUntilInStep(int busPhaseNow) {
+        int speed = 59000;
+        int phase = 0;
+        int busPhase = (int) ((busPhaseNow + 29L * 9 * 60600) % 180000);
+        int ticks = 30;
+        while (Math.abs(speed - 60600) > 150 || angle(phase, busPhase) > 5000) {
+            busPhase = (busPhase + 9 * 60600) % 180000;
+            speed = Math.min(60700, speed + 20);
+            phase = (phase + 9 * speed) % 180000;
+            ticks++;
+        }
+        return ticks;
+    }
+
+    private static int angle(int a, int b) {
+        int way = Math.abs(a - b);
+        return Math.min(way, 180000 - way);
+    }
+
+    private static void phaseBeginsAnew() {
+        ShipPower x = Scene.with();
+        x.start(0);
+        Scene.run(x, 37);
+        x.fail(0, 0);
+        Scene.run(x, 1);
+        Check.same("ON", Scene.state(x, 0), Scene.ON);
+        x.trip(0);
+        Scene.run(x, 200);
+        x.fail(0, Scene.NODE_DEAD);
+        Check.yes("started again", x.start(0));
+        Scene.run(x, 30);
+        Check.same("speed", x.set(0, 3), 59000);
+        Check.same("phase", x.set(0, 4), 0);
     }
 
     private static void emergencyTurnsAt60000() {
