@@ -12,6 +12,11 @@ public final class BlackoutTest {
         darkIsBrokenOff();
         classesGoOnInTheDark();
         waitingOnesWaitOn();
+        onlyConnectedOnesAreStored();
+        emergencyThatIsNotOff();
+        emergencyWithNodeDead();
+        onlyOneClauseInATick();
+        storedWithoutALiveGroup();
         Check.end("BlackoutTest");
     }
 
@@ -188,6 +193,92 @@ public final class BlackoutTest {
         Scene.run(x, 1);
         Check.same("tick 81: the next", x.count(1), 2);
         Check.same("at 1", x.count(2), 1);
+    }
+
+    /** "all consumers that are CONNECTED become STORED": no others. */
+    private static void onlyConnectedOnesAreStored() {
+        ShipPower x = Scene.onShore(58000);
+        int connected = Scene.asked(x, 0, 5, 10, 10);
+        int off = x.consumer(0, 5, 10, 10);
+        int shed = Scene.asked(x, 0, 0, 10, 10);
+        int waits = Scene.asked(x, 0, 5, 800, 10);
+        Scene.run(x, 1);
+        x.shore(false, 0);
+        Scene.run(x, 20);
+        Check.same("a blackout", x.count(1), 1);
+        Check.same("CONNECTED", x.look(connected, 0), Scene.STORED);
+        Check.same("OFF", x.look(off, 0), 0);
+        Check.same("SHED", x.look(shed, 0), Scene.SHED);
+        Check.same("WAITING", x.look(waits, 0), Scene.WAITING);
+        Check.same("one event", Scene.kept(x, 9, connected), 1);
+    }
+
+    /** "set 4 .. of those that are OFF": one that is COOLING is not started. */
+    private static void emergencyThatIsNotOff() {
+        ShipPower x = Scene.running(4);
+        x.trip(4);
+        Check.same("one blackout, of tick 20", x.count(1), 1);
+        x.shore(true, 60000);
+        x.takeShore();
+        Scene.run(x, 70);
+        x.shore(false, 0);
+        Scene.run(x, 20);
+        Check.same("another", x.count(1), 2);
+        Check.same("COOLING as it was", x.set(4, 6), 200 - 90);
+    }
+
+    private static void emergencyWithNodeDead() {
+        ShipPower x = Scene.with(0);
+        Scene.run(x, 20);
+        Check.same("a blackout", x.count(1), 1);
+        Check.same("4 is not started", Scene.state(x, 4), Scene.OFF);
+    }
+
+    /** "after the first clause one of the others at most, in a tick" */
+    private static void onlyOneClauseInATick() {
+        ShipPower x = Scene.with();
+        Scene.run(x, 20);
+        Check.same("the ladder is at 1", x.count(2), 1);
+        Scene.run(x, 9);
+        x.shore(true, 60000);
+        x.takeShore();
+        int light = Scene.asked(x, 0, 5, 10, 10);
+        Scene.run(x, 1);
+        Check.same("tick 30: at 2", x.count(2), 2);
+        Scene.run(x, 1);
+        x.shore(false, 0);
+        Check.same("CONNECTED", x.look(light, 0), Scene.CONNECTED);
+        Scene.run(x, 58);
+        Check.same("tick 89: six classes from 40 to 90", x.count(2), 2);
+        Scene.run(x, 1);
+        Check.same("tick 90: at 0, though dark for long", x.count(2), 0);
+        Check.same("one blackout", x.count(1), 1);
+        Check.same("CONNECTED", x.look(light, 0), Scene.CONNECTED);
+        Scene.run(x, 1);
+        Check.same("tick 91: the next blackout", x.count(1), 2);
+        Check.same("STORED", x.look(light, 0), Scene.STORED);
+    }
+
+    /** "whose group is live": one that misses its class stays STORED, until it is asked for no more. */
+    private static void storedWithoutALiveGroup() {
+        ShipPower x = Scene.onShore(60000);
+        int at0 = Scene.asked(x, 0, 5, 10, 10);
+        int at1 = Scene.asked(x, 1, 5, 10, 10);
+        x.shore(false, 0);
+        Scene.run(x, 20);
+        x.tie(false);
+        x.shore(true, 60000);
+        x.takeShore();
+        Scene.run(x, 100);
+        Check.same("the ladder is done", x.count(2), 0);
+        Check.same("bus 0 is live", x.look(at0, 0), Scene.CONNECTED);
+        Check.same("bus 1 is not", x.look(at1, 0), Scene.STORED);
+        x.tie(true);
+        Scene.run(x, 50);
+        Check.same("now it is, too late", x.look(at1, 0), Scene.STORED);
+        Check.same("asked for", x.ask(at1, true), Scene.STORED);
+        Check.same("asked for no more", x.ask(at1, false), 0);
+        Check.same("and again", x.ask(at1, true), Scene.CONNECTED);
     }
 
     private static void waitingOnesWaitOn() {

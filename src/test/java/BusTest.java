@@ -4,6 +4,9 @@ public final class BusTest {
         leads();
         wholeGroup();
         deadBus();
+        liveByUnloading();
+        notLiveByOthers();
+        liveByBus2();
         ratings();
         wrongOnes();
         Check.end("BusTest");
@@ -76,6 +79,46 @@ public final class BusTest {
         Check.same("nor phase", x.bus(0, 1), 0);
     }
 
+    /** "It is LIVE if a set at one of its buses is ON or UNLOADING." */
+    private static void liveByUnloading() {
+        ShipPower x = Scene.running(0, 1);
+        Scene.run(x, 192);
+        x.trip(0);
+        Check.same("UNLOADING", Scene.state(x, 1), Scene.UNLOADING);
+        for (int bus = 0; bus < 3; bus++) {
+            Check.same("live", x.bus(bus, 5), 1);
+            Check.same("capacity", x.bus(bus, 4), 1000);
+        }
+        Scene.run(x, 30);
+        Check.same("no more with its end", x.bus(0, 5), 0);
+    }
+
+    private static void notLiveByOthers() {
+        ShipPower x = Scene.with();
+        x.fail(1, Scene.NO_START);
+        x.start(1);
+        x.start(0);
+        Check.same("STARTING", x.bus(0, 5), 0);
+        Scene.run(x, 90);
+        Check.same("IDLE", Scene.state(x, 0), Scene.IDLE);
+        Check.same("BLOCKED", Scene.state(x, 1), Scene.BLOCKED);
+        Check.same("neither is at the bus", x.bus(0, 5), 0);
+        Check.same("no capacity", x.bus(0, 4), 0);
+        x.fail(0, 0);
+        Scene.run(x, 1);
+        Check.same("ON", x.bus(0, 5), 1);
+        x.trip(0);
+        Check.same("COOLING", x.bus(0, 5), 0);
+    }
+
+    /** Set 4 makes its own bus live, and no other. */
+    private static void liveByBus2() {
+        ShipPower x = Scene.running(4);
+        Check.same("bus 2", x.bus(2, 5), 1);
+        Check.same("bus 1", x.bus(1, 5), 0);
+        Check.same("bus 0", x.bus(0, 5), 0);
+    }
+
     private static void ratings() {
         int[] due = {1000, 1000, 1000, 1000, 200};
         int[] at = {0, 0, 1, 1, 2};
@@ -87,6 +130,11 @@ public final class BusTest {
             Check.same("capacity of " + set, x.bus(at[set], 4), due[set]);
             Check.same("not at another bus", x.bus((at[set] + 1) % 2, 4), 0);
         }
+        ShipPower shore = Scene.shoreTaken(60000);
+        shore.tie(false);
+        Scene.run(shore, 1);
+        Check.same("capacity of the shore", shore.bus(0, 4), 600);
+        Check.same("not at bus 1", shore.bus(1, 4), 0);
     }
 
     private static void wrongOnes() {

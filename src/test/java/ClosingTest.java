@@ -11,6 +11,8 @@ public final class ClosingTest {
         emergencyGoesAfterEachOfHundred();
         emergencyGoesByBus0();
         emergencySticks();
+        emergencyKeepsFeedersOpen();
+        hundredTicksAheadOfIt();
         feedersChange();
         feederSticks();
         neitherFeeder();
@@ -152,6 +154,32 @@ public final class ClosingTest {
         Check.same("ON all the same", Scene.state(x, 4), Scene.ON);
         Check.same("ticks 159 to 161", x.count(8), 3);
         Check.no("7 stays open", Scene.isClosed(x, 7));
+    }
+
+    /** "If set 4 is not ON": while it is, no feeder closes, live as buses 0 and 1 may be. */
+    private static void emergencyKeepsFeedersOpen() {
+        ShipPower x = bothPlants();
+        Scene.run(x, 98);
+        Check.same("tick 158", x.count(6), 1 | 16 | 64);
+        Check.same("bus 2 is apart", x.bus(2, 2), 2);
+    }
+
+    /** "in each of the last 100 ticks, this one included": also those in which set 4 was not ON. */
+    private static void hundredTicksAheadOfIt() {
+        ShipPower x = bothPlants();
+        Scene.run(x, 99);
+        Check.same("tick 159", Scene.state(x, 4), Scene.COOLING);
+        x.stick(7, true);
+        Scene.run(x, 100);
+        Check.same("bus 2 is dead", x.bus(2, 5), 0);
+        Check.yes("4 is started by hand", x.start(4));
+        Scene.run(x, 29);
+        Check.same("STARTING", Scene.state(x, 4), Scene.STARTING);
+        Scene.run(x, 1);
+        Check.same("ON and off again in one tick", Scene.state(x, 4), Scene.COOLING);
+        Check.same("COOLING", Scene.happened(x, 0), 289 * 10000 + 304);
+        Check.same("ON", Scene.happened(x, 1), 289 * 10000 + 204);
+        Check.same("IDLE", Scene.happened(x, 2), 289 * 10000 + 104);
     }
 
     /** Tie open, sets 0 and 2 ON, each at its side. */

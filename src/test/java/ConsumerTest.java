@@ -7,9 +7,16 @@ public final class ConsumerTest {
         askWhenDead();
         askWhenLive();
         askHeavy();
+        askHeavyFrom200();
         askWhenStoredOrShed();
-        demandOverTime();
-        demandOfWaiting();
+        askForShedOnes();
+        askNoMore();
+        refusedChangesNothing();
+        demandAfterAsk();
+        demandAfterATick();
+        demandBeginsAnew();
+        demandRoundsDown();
+        demandOnlyIfConnected();
         wrongNumbers();
         Check.end("ConsumerTest");
     }
@@ -25,14 +32,20 @@ public final class ConsumerTest {
         bad(-1, 0, 10, 10);
         bad(3, 0, 10, 10);
         bad(Integer.MIN_VALUE, 0, 10, 10);
+        bad(Integer.MAX_VALUE, 0, 10, 10);
         bad(0, -1, 10, 10);
         bad(0, 6, 10, 10);
+        bad(0, Integer.MIN_VALUE, 10, 10);
+        bad(0, Integer.MAX_VALUE, 10, 10);
         bad(0, 0, 0, 10);
         bad(0, 0, -5, 10);
         bad(0, 0, 801, 10);
         bad(0, 0, Integer.MAX_VALUE, 10);
         bad(0, 0, 10, 9);
         bad(0, 0, 10, 61);
+        bad(0, 0, Integer.MIN_VALUE, 10);
+        bad(0, 0, 10, Integer.MAX_VALUE);
+        bad(0, 0, 10, Integer.MIN_VALUE);
     }
 
     private static void edges() {
@@ -40,6 +53,11 @@ public final class ConsumerTest {
         Check.same("least of all", x.consumer(0, 0, 1, 10), 0);
         Check.same("most of all", x.consumer(2, 5, 800, 60), 1);
         Check.same("two of them", x.count(3), 2);
+        for (int bus = 0; bus < 3; bus++) {
+            for (int cls = 0; cls < 6; cls++) {
+                Check.same("each bus and class", x.consumer(bus, cls, 10, 10), 2 + 6 * bus + cls);
+            }
+        }
         Check.same("it is OFF", x.look(0, 0), 0);
         Check.same("without demand", x.look(1, 1), 0);
     }
@@ -120,39 +138,152 @@ public final class ConsumerTest {
         Check.same("connected again by ask", y.ask(shed, true), Scene.CONNECTED);
     }
 
-    /** Twenty ticks: those after ask(), and with the one in which a tick connects it. */
-    private static void demandOverTime() {
+    /** "HEAVY: 200 kilowatts or more": with 199 of 1000 left there is room for a light one of any size. */
+    private static void askHeavyFrom200() {
         ShipPower x = Scene.running(0);
-        int one = Scene.asked(x, 0, 5, 15, 15);
-        Check.same("ahead of its first tick", x.look(one, 1), 22);
+        Scene.burden(x, 801);
+        Check.same("199 is not heavy", x.ask(x.consumer(0, 5, 199, 60), true), Scene.CONNECTED);
+
+        ShipPower y = Scene.running(0);
+        Scene.burden(y, 801);
+        Check.same("200 is", y.ask(y.consumer(0, 5, 200, 10), true), Scene.WAITING);
+
+        ShipPower z = Scene.running(0);
+        Scene.burden(z, 800);
+        Check.same("200 of 200", z.ask(z.consumer(0, 5, 200, 10), true), Scene.CONNECTED);
+    }
+
+    /** "with true one that is not CONNECTED and not STORED": a SHED one as any other. */
+    private static void askForShedOnes() {
+        ShipPower x = Scene.onShore(58000);
+        int light = Scene.asked(x, 0, 0, 10, 10);
+        int heavy = Scene.asked(x, 0, 0, 300, 20);
+        Scene.run(x, 1);
+        Check.same("the light one is shed", x.look(light, 0), Scene.SHED);
+        Check.same("the heavy one has room by that", x.look(heavy, 0), Scene.CONNECTED);
         Scene.run(x, 20);
-        Check.same("twentieth tick", x.look(one, 1), 22);
-        Check.same("the load of that", Scene.load(x, 0), 22);
+        Check.same("the heavy one is shed", x.look(heavy, 0), Scene.SHED);
+        Scene.asked(x, 0, 5, 1, 10);
+        Check.same("600 of 599", x.ask(heavy, true), Scene.WAITING);
+        Check.same("WAITING, and asked again", x.ask(heavy, true), Scene.WAITING);
+        x.shore(false, 0);
+        Check.same("at a dead bus", x.ask(light, true), Scene.WAITING);
+    }
+
+    /** "with false it is OFF": in whatever state it was. */
+    private static void askNoMore() {
+        ShipPower x = Scene.onShore(58000);
+        int shed = Scene.asked(x, 0, 0, 10, 10);
+        int connected = Scene.asked(x, 0, 5, 10, 10);
+        int stored = Scene.asked(x, 0, 5, 10, 10);
+        int waits = Scene.asked(x, 0, 5, 800, 10);
+        Scene.run(x, 1);
+        int events = x.count(5);
+        Check.same("SHED", x.look(shed, 0), Scene.SHED);
+        Check.same("off", x.ask(shed, false), 0);
+        Check.same("CONNECTED", x.look(connected, 0), Scene.CONNECTED);
+        Check.same("off", x.ask(connected, false), 0);
+        Check.same("WAITING", x.look(waits, 0), Scene.WAITING);
+        Check.same("off", x.ask(waits, false), 0);
+        Check.same("OFF", x.ask(waits, false), 0);
+        Check.same("no events of that", x.count(5), events);
+        x.shore(false, 0);
+        Scene.run(x, 20);
+        Check.same("STORED", x.look(stored, 0), Scene.STORED);
+        Check.same("off", x.ask(stored, false), 0);
+        Check.same("seen so", x.look(stored, 0), 0);
+        x.shore(true, 60000);
+        x.takeShore();
+        Scene.run(x, 100);
+        Check.same("it does not come back", x.look(stored, 0), 0);
+    }
+
+    private static void refusedChangesNothing() {
+        ShipPower x = Scene.onShore(60000);
+        int light = x.consumer(0, 5, 10, 10);
+        int events = x.count(5);
+        Check.refused("ask 1", IndexOutOfBoundsException.class, () -> x.ask(1, true));
+        Check.refused("ask -1", IndexOutOfBoundsException.class, () -> x.ask(-1, true));
+        Check.same("OFF", x.look(light, 0), 0);
+        Check.same("no events", x.count(5), events);
+    }
+
+    /** "in the first 20 ticks of that (.. if that was between ticks, the next one), then its kilowatts" */
+    private static void demandAfterAsk() {
+        ShipPower x = Scene.running(0);
+        int one = Scene.asked(x, 0, 5, 15, 20);
+        Check.same("ahead of its first tick", x.look(one, 1), 30);
+        Scene.run(x, 20);
+        Check.same("twentieth tick", x.look(one, 1), 30);
+        Check.same("the load of that", Scene.load(x, 0), 30);
         Scene.run(x, 1);
         Check.same("after that", x.look(one, 1), 15);
         Check.same("the load too", Scene.load(x, 0), 15);
-
-        ShipPower y = Scene.with(0);
-        y.start(0);
-        int waits = Scene.asked(y, 0, 5, 100, 13);
-        Scene.run(y, 30);
-        Check.same("connected in tick 30", y.look(waits, 0), Scene.CONNECTED);
-        Check.same("the load does not know of it", Scene.load(y, 0), 0);
-        Scene.run(y, 19);
-        Check.same("tick 49 is the twentieth", y.look(waits, 1), 130);
-        Check.same("load in it", Scene.load(y, 0), 130);
-        Scene.run(y, 1);
-        Check.same("tick 50", y.look(waits, 1), 100);
-        y.ask(waits, false);
-        y.ask(waits, true);
-        Check.same("it begins anew", y.look(waits, 1), 130);
     }
 
-    private static void demandOfWaiting() {
-        ShipPower x = new ShipPower();
-        int one = Scene.asked(x, 0, 5, 100, 20);
-        Check.same("waiting ones have none", x.look(one, 1), 0);
-        Check.same("nor has the group", x.bus(0, 3), 0);
+    /** "(the tick in which it was connected is the first ..)" */
+    private static void demandAfterATick() {
+        ShipPower x = Scene.with(0);
+        x.start(0);
+        int waits = Scene.asked(x, 0, 5, 100, 13);
+        Scene.run(x, 30);
+        Check.same("connected in tick 30", x.look(waits, 0), Scene.CONNECTED);
+        Check.same("its demand", x.look(waits, 1), 130);
+        Check.same("the load does not know of it", Scene.load(x, 0), 0);
+        Scene.run(x, 19);
+        Check.same("tick 49 is the twentieth", x.look(waits, 1), 130);
+        Check.same("load in it", Scene.load(x, 0), 130);
+        Scene.run(x, 1);
+        Check.same("tick 50", x.look(waits, 1), 100);
+        Check.same("load in it", Scene.load(x, 0), 100);
+    }
+
+    private static void demandBeginsAnew() {
+        ShipPower x = Scene.running(0);
+        int one = Scene.asked(x, 0, 5, 100, 13);
+        Scene.run(x, 30);
+        Check.same("its kilowatts", x.look(one, 1), 100);
+        x.ask(one, true);
+        Check.same("asked for once more", x.look(one, 1), 100);
+        x.ask(one, false);
+        x.ask(one, true);
+        Check.same("connected anew", x.look(one, 1), 130);
+        Scene.run(x, 20);
+        Check.same("for 20 ticks", x.look(one, 1), 130);
+        Scene.run(x, 1);
+        Check.same("no longer", x.look(one, 1), 100);
+    }
+
+    /** "kilowatts * factor / 10", "Quotients are rounded down." */
+    private static void demandRoundsDown() {
+        int[][] due = {{15, 15, 22}, {1, 19, 1}, {1, 20, 2}, {199, 59, 1174}, {1, 10, 1}, {33, 33, 108}};
+        ShipPower x = Scene.running(0);
+        for (int[] one : due) {
+            int number = Scene.asked(x, 0, 5, one[0], one[1]);
+            Check.same(one[0] + " by " + one[1], x.look(number, 1), one[2]);
+        }
+    }
+
+    /** "Its DEMAND is 0 if it is not CONNECTED" */
+    private static void demandOnlyIfConnected() {
+        ShipPower x = Scene.onShore(58000);
+        int off = x.consumer(0, 5, 100, 20);
+        int shed = Scene.asked(x, 0, 0, 100, 10);
+        int waits = Scene.asked(x, 0, 5, 700, 20);
+        int stored = Scene.asked(x, 0, 5, 100, 20);
+        Check.same("CONNECTED", x.look(stored, 1), 200);
+        Scene.run(x, 1);
+        Check.same("OFF", x.look(off, 1), 0);
+        Check.same("SHED is its state", x.look(shed, 0), Scene.SHED);
+        Check.same("SHED", x.look(shed, 1), 0);
+        Check.same("WAITING is its state", x.look(waits, 0), Scene.WAITING);
+        Check.same("WAITING", x.look(waits, 1), 0);
+        Check.same("the group's", x.bus(0, 3), 200);
+        x.shore(false, 0);
+        Scene.run(x, 20);
+        Check.same("STORED is its state", x.look(stored, 0), Scene.STORED);
+        Check.same("STORED", x.look(stored, 1), 0);
+        Check.same("the group's then", x.bus(0, 3), 0);
     }
 
     private static void wrongNumbers() {

@@ -3,6 +3,7 @@ public final class CountTest {
     public static void main(String[] args) {
         numbers();
         wrongOnes();
+        tellingChangesNothing();
         stuck();
         Check.end("CountTest");
     }
@@ -34,6 +35,14 @@ public final class CountTest {
         Check.same("9", x.count(9), ShipPower.NONE);
         Check.same("the least", x.count(Integer.MIN_VALUE), ShipPower.NONE);
         Check.same("the greatest", x.count(Integer.MAX_VALUE), ShipPower.NONE);
+    }
+
+    private static void tellingChangesNothing() {
+        ShipPower x = Scene.running(0);
+        for (int what = -1; what < 10; what++) {
+            Check.same("twice the same", x.count(what), x.count(what));
+        }
+        Check.same("ticks", x.count(0), 30);
     }
 
     /** Every way in which a breaker that sticks is to open or close. */

@@ -3,6 +3,9 @@ public final class EventTest {
     public static void main(String[] args) {
         wrongOnes();
         lastOnes();
+        thirtyOneTwoThree();
+        roundAndRound();
+        ticksOfEvents();
         lifeOfASet();
         retriesAreNone();
         Check.end("EventTest");
@@ -38,6 +41,58 @@ public final class EventTest {
             Check.same("event " + k, Scene.happened(x, k), 300000 + 700 + 39 - k);
         }
         bad(x, 32, 0);
+    }
+
+    /** "EVENTS are kept, the last 32" */
+    private static void thirtyOneTwoThree() {
+        ShipPower x = Scene.onShore(60000);
+        int before = x.count(5);
+        int light = x.consumer(0, 5, 1, 10);
+        for (int i = before; i < 31; i++) {
+            x.ask(light, false);
+            x.ask(light, true);
+        }
+        Check.same("31", x.count(5), 31);
+        Check.same("the first of 31", Scene.happened(x, 30), 105);
+        bad(x, 31, 0);
+        x.ask(light, false);
+        x.ask(light, true);
+        Check.same("the first of 32", Scene.happened(x, 31), 105);
+        bad(x, 32, 0);
+        x.ask(light, false);
+        x.ask(light, true);
+        Check.same("33", x.count(5), 33);
+        Check.same("the second of 33", Scene.happened(x, 31), 10000 + 205);
+        bad(x, 32, 0);
+    }
+
+    /** More than twice as many as are kept. */
+    private static void roundAndRound() {
+        ShipPower x = Scene.onShore(60000);
+        int[] all = new int[10];
+        for (int i = 0; i < 10; i++) {
+            all[i] = x.consumer(0, 5, 1, 10);
+        }
+        for (int i = 0; i < 75; i++) {
+            x.ask(all[i % 10], false);
+            x.ask(all[i % 10], true);
+        }
+        for (int k = 0; k < 32; k++) {
+            Check.same("event " + k, Scene.happened(x, k), 10000 + 700 + (74 - k) % 10);
+        }
+    }
+
+    /** "the tick (between ticks: that of the latest one)" */
+    private static void ticksOfEvents() {
+        ShipPower x = new ShipPower();
+        x.start(1);
+        Check.same("ahead of the first tick", x.event(0, 0), 0);
+        Scene.run(x, 7);
+        x.start(2);
+        Check.same("after tick 7", x.event(0, 0), 7);
+        Scene.run(x, 23);
+        Check.same("in tick 30", Scene.kept(x, 2, 1), 1);
+        Check.same("its number", x.event(0, 0), 30);
     }
 
     private static void lifeOfASet() {

@@ -4,8 +4,11 @@ public final class LoadTest {
         frequencyByLoad();
         frequencyGoesBy40();
         frequencyIsNotBelow55000();
+        frequencyJustAbove55000();
         groupsByThemselves();
         evenShares();
+        leftOverStaysInTheGroup();
+        leftOverAlsoWithoutWeight();
         governors();
         governorsByRating();
         unloadingShares();
@@ -58,6 +61,53 @@ public final class LoadTest {
         }
         Scene.run(x, 200);
         Check.same("least", x.bus(2, 0), 55000);
+    }
+
+    /** "the TARGET is 60600 - 1200 * demand / capacity, 55000 at least": 6 for each kilowatt of set 4. */
+    private static void frequencyJustAbove55000() {
+        int[] demands = {932, 933, 934};
+        int[] due = {55008, 55002, 55000};
+        for (int i = 0; i < demands.length; i++) {
+            ShipPower x = Scene.running(4);
+            x.stick(4, true);
+            for (int rest = demands[i]; rest > 0; rest -= 199) {
+                Scene.asked(x, 2, 5, Math.min(rest, 199), 10);
+            }
+            Scene.run(x, 200);
+            Check.same("demand " + demands[i], x.bus(2, 0), due[i]);
+        }
+    }
+
+    /** "what is left over of the demand goes .. to the sets by numbers": those of the group. */
+    private static void leftOverStaysInTheGroup() {
+        ShipPower x = Scene.with(0, 1, 2, 3);
+        x.tie(false);
+        for (int set = 0; set < 4; set++) {
+            x.start(set);
+        }
+        Scene.run(x, 30);
+        Scene.asked(x, 0, 5, 10, 10);
+        Scene.asked(x, 1, 5, 21, 10);
+        Scene.run(x, 1);
+        loadsAre("the one left over goes to 2", x, 5, 5, 11, 10);
+        Scene.asked(x, 2, 5, 1, 10);
+        Scene.run(x, 1);
+        loadsAre("one at each side", x, 6, 5, 11, 10);
+    }
+
+    /** Set 0 cannot leave and has weight 0: no share, but it is the first of what is left over. */
+    private static void leftOverAlsoWithoutWeight() {
+        ShipPower x = Scene.running(0, 1, 2);
+        x.order(1 | 2 << 2 | 3 << 4 | 0 << 6);
+        x.mode(3);
+        Scene.run(x, 190);
+        Check.same("0 goes", Scene.state(x, 0), Scene.UNLOADING);
+        x.stick(0, true);
+        Scene.run(x, 25);
+        Check.same("weight 0", x.set(0, 5), 0);
+        Scene.burden(x, 101);
+        Scene.run(x, 1);
+        loadsAre("one left over", x, 1, 50, 50, 0);
     }
 
     private static void groupsByThemselves() {

@@ -19,6 +19,12 @@ public final class ManagerTest {
         lastInOrderGoes();
         nodeDeadStays();
         nodeDeadCounts();
+        startingAndIdleAreComing();
+        unloadingIsNotComing();
+        coolingIsNotComing();
+        onlyWhatIsOffIsCalled();
+        heavyFrom200();
+        unloadingFallsBy50();
         unloadingSticks();
         Check.end("ManagerTest");
     }
@@ -297,6 +303,97 @@ public final class ManagerTest {
         Scene.run(x, 100);
         Check.same("1 is IDLE", Scene.state(x, 1), Scene.IDLE);
         Check.same("2 is not called", Scene.state(x, 2), Scene.OFF);
+    }
+
+    /** "COMING is the sum of ratings of its sets 0 .. 3 that are STARTING, IDLE or ON" */
+    private static void startingAndIdleAreComing() {
+        ShipPower x = Scene.running(0);
+        Scene.run(x, 60);
+        x.fail(1, 0);
+        x.fail(2, 0);
+        Scene.burden(x, 701);
+        Scene.run(x, 10);
+        Check.same("called in tick 100", Scene.happened(x, 0), 100 * 10000 + 501);
+        Scene.run(x, 20);
+        Check.same("STARTING: no other is called", Scene.state(x, 2), Scene.OFF);
+        x.fail(1, Scene.NODE_DEAD);
+        Scene.run(x, 40);
+        Check.same("it cannot close", Scene.state(x, 1), Scene.IDLE);
+        Check.same("IDLE: no other is called", Scene.state(x, 2), Scene.OFF);
+    }
+
+    private static void unloadingIsNotComing() {
+        ShipPower x = Scene.running(0, 1);
+        Scene.run(x, 190);
+        Check.same("1 goes", Scene.state(x, 1), Scene.UNLOADING);
+        x.stick(1, true);
+        x.fail(2, 0);
+        Scene.burden(x, 701);
+        Scene.run(x, 20);
+        Check.same("UNLOADING, at the bus", x.bus(0, 4), 2000);
+        Check.same("2 is called", Scene.state(x, 2), Scene.STARTING);
+    }
+
+    private static void coolingIsNotComing() {
+        ShipPower x = Scene.running(0, 1);
+        x.fail(2, 0);
+        Scene.burden(x, 701);
+        x.trip(1);
+        Scene.run(x, 10);
+        Check.same("COOLING", Scene.state(x, 1), Scene.COOLING);
+        Check.same("2 is called", Scene.state(x, 2), Scene.STARTING);
+    }
+
+    /** "the first in the start order of its sets that is OFF": not one that is COOLING, BLOCKED, IDLE or STARTING. */
+    private static void onlyWhatIsOffIsCalled() {
+        ShipPower x = Scene.running(0);
+        x.mode(3);
+        Scene.burden(x, 10);
+        x.fail(1, Scene.NO_START);
+        x.start(1);
+        Scene.run(x, 90);
+        Check.same("BLOCKED", Scene.state(x, 1), Scene.BLOCKED);
+        x.fail(2, 0);
+        x.fail(3, 0);
+        x.start(2);
+        Scene.run(x, 29);
+        x.fail(2, Scene.NODE_DEAD);
+        Scene.run(x, 5);
+        Check.same("IDLE", Scene.state(x, 2), Scene.IDLE);
+        Scene.burden(x, 1100);
+        Scene.run(x, 6);
+        Check.same("the one that is OFF", Scene.state(x, 3), Scene.STARTING);
+        int events = x.count(5);
+        Scene.run(x, 20);
+        Check.same("then there is none", x.count(5), events);
+    }
+
+    /** "HEAVY: 200 kilowatts or more", by need: of 999 a light one leaves room, and a heavy one does not. */
+    private static void heavyFrom200() {
+        int[] kilowatts = {199, 200};
+        for (int i = 0; i < 2; i++) {
+            ShipPower x = shoreAtBus0(2, 3);
+            x.start(2);
+            // 36 tenths: 716 of the light one, and 720.
+            Scene.asked(x, 1, 5, kilowatts[i], 36);
+            Scene.run(x, 20);
+            Check.same("WAITING", x.look(0, 0), Scene.WAITING);
+            Check.same("3 is called for " + kilowatts[i], Scene.state(x, 3), i == 0 ? Scene.OFF : Scene.STARTING);
+        }
+    }
+
+    /** "the weight falls by 50; with 0 its breaker opens" */
+    private static void unloadingFallsBy50() {
+        ShipPower x = Scene.running(0, 1);
+        Scene.run(x, 189);
+        for (int weight = 950; weight > 0; weight -= 50) {
+            x.tick();
+            Check.same("weight", x.set(1, 5), weight);
+            Check.same("UNLOADING", Scene.state(x, 1), Scene.UNLOADING);
+        }
+        x.tick();
+        Check.same("COOLING", Scene.state(x, 1), Scene.COOLING);
+        Check.no("open", Scene.isClosed(x, 1));
     }
 
     private static void unloadingSticks() {

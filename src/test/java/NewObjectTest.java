@@ -1,30 +1,69 @@
 /** Promise 1: a new object. */
 public final class NewObjectTest {
     public static void main(String[] args) {
+        setsAreOff();
+        busesAreDead();
+        countsAreNone();
+        breakersAtFirst();
+        noConsumers();
+        noEvents();
+        noShore();
+        modeIsSea();
+        objectsAreApart();
+        Check.end("NewObjectTest");
+    }
+
+    private static void setsAreOff() {
         ShipPower x = new ShipPower();
         for (int set = 0; set < 6; set++) {
             for (int what = 0; what < 9; what++) {
                 Check.same("set(" + set + ", " + what + ")", x.set(set, what), 0);
             }
         }
+    }
+
+    private static void busesAreDead() {
+        ShipPower x = new ShipPower();
         for (int bus = 0; bus < 3; bus++) {
             for (int what = 0; what < 6; what++) {
                 Check.same("bus(" + bus + ", " + what + ")", x.bus(bus, what), 0);
             }
         }
+    }
+
+    private static void countsAreNone() {
+        ShipPower x = new ShipPower();
         Check.same("tick 0", x.count(0), 0);
         Check.same("no blackout", x.count(1), 0);
         Check.same("the ladder", x.count(2), 0);
-        Check.same("no consumers", x.count(3), 0);
         Check.same("none shed", x.count(4), 0);
-        Check.same("no events", x.count(5), 0);
-        Check.same("the tie and feeder 7 are closed", x.count(6), 192);
         Check.same("the tie is not ordered", x.count(7), 0);
         Check.same("nothing stuck", x.count(8), 0);
-        Check.no("no shore", x.takeShore());
-        modeIsSea();
-        objectsAreApart();
-        Check.end("NewObjectTest");
+    }
+
+    /** "At first 6 and 7 are closed, all others open." */
+    private static void breakersAtFirst() {
+        Check.same("the tie and feeder 7", new ShipPower().count(6), 64 | 128);
+    }
+
+    private static void noConsumers() {
+        ShipPower x = new ShipPower();
+        Check.same("none", x.count(3), 0);
+        Check.refused("look", IndexOutOfBoundsException.class, () -> x.look(0, 0));
+        Check.refused("ask", IndexOutOfBoundsException.class, () -> x.ask(0, true));
+        Check.refused("ask no more", IndexOutOfBoundsException.class, () -> x.ask(0, false));
+    }
+
+    private static void noEvents() {
+        ShipPower x = new ShipPower();
+        Check.same("none", x.count(5), 0);
+        Check.refused("event", IndexOutOfBoundsException.class, () -> x.event(0, 0));
+    }
+
+    private static void noShore() {
+        ShipPower x = new ShipPower();
+        Check.no("it cannot be taken", x.takeShore());
+        Check.same("OFF", Scene.state(x, 5), Scene.OFF);
     }
 
     /** Reserve 300: one set of 1000 is enough with a demand of 700, not with 701. */

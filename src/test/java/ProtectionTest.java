@@ -7,6 +7,9 @@ public final class ProtectionTest {
         heatJustBelow();
         heatWhileItSticks();
         watchEdge();
+        watchBelowTheEdge();
+        watchRoundsDown();
+        watchCountsOnlyOnes();
         watchIsBrokenOff();
         watchForgetsWhatLeft();
         watchNeedsThree();
@@ -16,6 +19,7 @@ public final class ProtectionTest {
         lowFrequencyTripsAll();
         lowFrequencyWhileItSticks();
         lowIsKeptForTheLead();
+        lowEndsWithADeadGroup();
         Check.end("ProtectionTest");
     }
 
@@ -112,6 +116,45 @@ public final class ProtectionTest {
         z.fail(1, Scene.LOW);
         Scene.run(z, 100);
         Check.same("LOW: 84 for 252", Scene.state(z, 1), Scene.BLOCKED);
+    }
+
+    /** LOW: a ninth where a third is due, 2/9 below: 125 with 563, 126 with 564. */
+    private static void watchBelowTheEdge() {
+        ShipPower x = Scene.running(0, 1, 2);
+        Scene.burden(x, 564);
+        x.fail(2, Scene.LOW);
+        Scene.run(x, 99);
+        Check.same("62 for 188", Scene.load(x, 2), 62);
+        Check.same("99 ticks", Scene.state(x, 2), Scene.ON);
+        Scene.run(x, 1);
+        Check.same("100 ticks", Scene.state(x, 2), Scene.BLOCKED);
+    }
+
+    /** "Quotients are rounded down": 187.67 less 62 would be more than 125. */
+    private static void watchRoundsDown() {
+        ShipPower x = Scene.running(0, 1, 2);
+        Scene.burden(x, 563);
+        x.fail(2, Scene.LOW);
+        Scene.run(x, 150);
+        Check.same("62 for 187", Scene.load(x, 2), 62);
+        Check.same("just 125 away", Scene.state(x, 2), Scene.ON);
+    }
+
+    /** "by ratings of all sets of its group that are ON alone", "at least two others ON": UNLOADING ones are none. */
+    private static void watchCountsOnlyOnes() {
+        ShipPower x = Scene.running(0, 1, 2);
+        Scene.run(x, 190);
+        Check.same("2 goes", Scene.state(x, 2), Scene.UNLOADING);
+        x.stick(2, true);
+        Scene.run(x, 25);
+        x.mode(3);
+        Scene.burden(x, 900);
+        x.fail(1, Scene.HIGH);
+        Scene.run(x, 150);
+        Check.same("600 for 450", Scene.load(x, 1), 600);
+        Check.same("2 is there, but not ON", Scene.state(x, 2), Scene.UNLOADING);
+        Check.same("so 1 stays", Scene.state(x, 1), Scene.ON);
+        Check.same("an UNLOADING one is not watched", x.count(8), 157);
     }
 
     private static void watchIsBrokenOff() {
@@ -252,6 +295,20 @@ public final class ProtectionTest {
         x.stick(5, false);
         Scene.run(x, 1);
         Check.same("COOLING", Scene.state(x, 5), Scene.COOLING);
+    }
+
+    /** "else (or if it is not live) none": 15 ticks low, one dead, and 19 low again. */
+    private static void lowEndsWithADeadGroup() {
+        ShipPower x = Scene.shoreTaken(56999);
+        Scene.run(x, 15);
+        x.shore(false, 0);
+        Scene.run(x, 1);
+        x.shore(true, 56999);
+        x.takeShore();
+        Scene.run(x, 19);
+        Check.same("19 ticks anew", Scene.state(x, 5), Scene.ON);
+        Scene.run(x, 1);
+        Check.same("20 ticks", Scene.state(x, 5), Scene.COOLING);
     }
 
     /** Bus 1 is low for 11 ticks as a lead of its own, for 2 with bus 0 as its lead, and then for 9 again. */

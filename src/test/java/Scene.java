@@ -71,6 +71,35 @@ final class Scene {
         }
     }
 
+    /**
+     * Set 0 alone, with 500 of its 1000: the bus runs at 60000, so that its phase, growing by three rounds a tick,
+     * stands still, at a multiple of nine that is asked for. Consumers 0, 1 and 2 are the 500; 3 and 4 are OFF.
+     */
+    static ShipPower standing(int phase) {
+        ShipPower x = running(0);
+        burden(x, 500);
+        run(x, 100);
+        turnBack(x, 0, Math.floorMod(x.bus(0, 1) - phase, 180000));
+        return x;
+    }
+
+    /** Two consumers slow a bus that stands still down: 34 of 1000 by 40 millihertz, 1 by one. */
+    static void turnBack(ShipPower x, int bus, int way) {
+        int[] kilowatts = {34, 1};
+        int[] each = {9 * 40, 9};
+        int rest = way;
+        for (int i = 0; i < 2; i++) {
+            int brake = x.consumer(bus, 5, kilowatts[i], 10);
+            if (rest >= each[i]) {
+                x.ask(brake, true);
+                run(x, rest / each[i]);
+                x.ask(brake, false);
+                rest %= each[i];
+            }
+        }
+        run(x, 1);
+    }
+
     /** No set but the shore, which is ON with the next tick. */
     static ShipPower shoreTaken(int milliHertz) {
         ShipPower x = with();

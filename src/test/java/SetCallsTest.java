@@ -3,9 +3,16 @@ public final class SetCallsTest {
     public static void main(String[] args) {
         fail();
         failMendsBlocked();
+        failLeavesTheRest();
         start();
+        startOnlyIfOff();
         trip();
+        tripOnlyAtItsBus();
+        tripWhileUnloading();
         whatIsTold();
+        speedOnlyIfIdle();
+        leftOnlyIfItCounts();
+        triesOfASet();
         wrongOnes();
         Check.end("SetCallsTest");
     }
@@ -22,6 +29,8 @@ public final class SetCallsTest {
         Check.same("nor is it told so", x.set(5, 8), 0);
         Check.no("set -1", x.fail(-1, 1));
         Check.no("set 6", x.fail(6, 0));
+        Check.no("set far off", x.fail(Integer.MIN_VALUE, 0));
+        Check.no("failure far off", x.fail(0, Integer.MAX_VALUE));
         Check.no("failure 5", x.fail(0, 5));
         Check.no("failure -1", x.fail(0, -1));
         Check.same("a refused one changes nothing", x.set(0, 8), 0);
@@ -52,6 +61,45 @@ public final class SetCallsTest {
         Scene.run(x, 30);
         Check.same("it comes", Scene.state(x, 1), Scene.ON);
         Check.same("tries 0 again", x.set(1, 7), 0);
+    }
+
+    /** "one that is BLOCKED and has 0 told is OFF": one in another state stays in it. */
+    private static void failLeavesTheRest() {
+        ShipPower x = Scene.running(0, 1);
+        x.trip(1);
+        x.start(3);
+        for (int how = 4; how >= 0; how--) {
+            x.fail(0, how);
+            x.fail(1, how);
+            x.fail(2, how);
+            x.fail(3, how);
+            Check.same("ON", Scene.state(x, 0), Scene.ON);
+            Check.same("COOLING", x.set(1, 6), 200);
+            Check.same("OFF", Scene.state(x, 2), Scene.OFF);
+            Check.same("STARTING", x.set(3, 6), 30);
+        }
+    }
+
+    /** "A set 0 .. 4 that is OFF .. false if it is not so" */
+    private static void startOnlyIfOff() {
+        ShipPower x = Scene.running(0, 1);
+        Scene.run(x, 190);
+        Check.same("UNLOADING", Scene.state(x, 1), Scene.UNLOADING);
+        int events = x.count(5);
+        Check.no("UNLOADING", x.start(1));
+        Check.no("ON", x.start(0));
+        x.trip(0);
+        Check.no("COOLING", x.start(0));
+        Check.same("one event, of the trip", x.count(5), events + 1);
+        Check.same("ticks left", x.set(0, 6), 200);
+        Scene.run(x, 200);
+        Check.same("OFF", Scene.state(x, 0), Scene.OFF);
+        Check.yes("OFF", x.start(0));
+        Scene.run(x, 5);
+        Check.no("STARTING", x.start(0));
+        Check.same("it does not begin anew", x.set(0, 6), 25);
+        Check.no("far off", x.start(Integer.MAX_VALUE));
+        Check.no("far off below", x.start(Integer.MIN_VALUE));
     }
 
     private static void start() {
@@ -114,6 +162,94 @@ public final class SetCallsTest {
         y.tick();
         Check.yes("the shore", y.trip(5));
         Check.same("bus 0 is dead", y.bus(0, 5), 0);
+    }
+
+    /** "A set that is ON or UNLOADING trips .. false if it is not so" */
+    private static void tripOnlyAtItsBus() {
+        ShipPower x = Scene.with();
+        Check.no("OFF", x.trip(0));
+        x.start(0);
+        Check.no("STARTING", x.trip(0));
+        Scene.run(x, 30);
+        Check.same("IDLE is its state", Scene.state(x, 0), Scene.IDLE);
+        Check.no("IDLE", x.trip(0));
+        x.fail(0, 0);
+        x.tick();
+        Check.yes("ON", x.trip(0));
+        Check.no("COOLING", x.trip(0));
+        x.fail(1, Scene.NO_START);
+        x.start(1);
+        Scene.run(x, 90);
+        Check.same("BLOCKED is its state", Scene.state(x, 1), Scene.BLOCKED);
+        Check.no("BLOCKED", x.trip(1));
+        Check.same("one trip", Scene.kept(x, 3, 0), 1);
+        Check.no("far off", x.trip(Integer.MAX_VALUE));
+        Check.no("far off below", x.trip(Integer.MIN_VALUE));
+        Check.same("nothing stuck", x.count(8), 0);
+    }
+
+    private static void tripWhileUnloading() {
+        ShipPower x = Scene.running(0, 1);
+        Scene.run(x, 195);
+        Check.same("UNLOADING", Scene.state(x, 1), Scene.UNLOADING);
+        x.stick(1, true);
+        Check.no("it sticks", x.trip(1));
+        Check.same("UNLOADING still", Scene.state(x, 1), Scene.UNLOADING);
+        x.stick(1, false);
+        Check.yes("trips", x.trip(1));
+        Check.same("with 200 left, not 100", x.set(1, 6), 200);
+        Check.no("open", Scene.isClosed(x, 1));
+    }
+
+    /** "(3 and 4: 0 if it is not IDLE ..)" */
+    private static void speedOnlyIfIdle() {
+        ShipPower x = Scene.running(0);
+        Scene.run(x, 100);
+        x.shore(true, 60001);
+        x.takeShore();
+        x.tick();
+        Check.same("IDLE: speed", x.set(5, 3), 60001);
+        Check.same("IDLE: phase", x.set(5, 4), 9);
+        x.shore(false, 0);
+        Check.same("OFF: no speed", x.set(5, 3), 0);
+        Check.same("OFF: no phase", x.set(5, 4), 0);
+        x.shore(true, 60700);
+        x.takeShore();
+        Check.yes("it comes", x.ticks(300) < 300);
+        Check.same("ON: no speed", x.set(5, 3), 0);
+        Check.same("ON: no phase", x.set(5, 4), 0);
+    }
+
+    /** "(.. 6: 0 if it is not STARTING or COOLING)" */
+    private static void leftOnlyIfItCounts() {
+        ShipPower x = Scene.with();
+        x.fail(1, Scene.NO_START);
+        x.start(0);
+        x.start(1);
+        Scene.run(x, 30);
+        Check.same("IDLE", x.set(0, 6), 0);
+        Scene.run(x, 60);
+        Check.same("BLOCKED", x.set(1, 6), 0);
+        x.fail(1, 0);
+        Check.same("OFF", x.set(1, 6), 0);
+        x.fail(0, 0);
+        Scene.run(x, 1);
+        Check.same("ON", x.set(0, 6), 0);
+        x.trip(0);
+        Scene.run(x, 1);
+        Check.same("COOLING", x.set(0, 6), 199);
+    }
+
+    private static void triesOfASet() {
+        ShipPower x = Scene.with();
+        x.fail(3, Scene.NO_START);
+        x.start(3);
+        for (int tries = 0; tries < 3; tries++) {
+            Scene.run(x, 29);
+            Check.same("tries", x.set(3, 7), tries);
+            Scene.run(x, 1);
+            Check.same("one more", x.set(3, 7), tries + 1);
+        }
     }
 
     private static void whatIsTold() {

@@ -8,6 +8,10 @@ public final class SheddingTest {
         noConsumerIsNoShedding();
         groups();
         onlyConnectedOnes();
+        deadGroupShedsNothing();
+        byHeatOfTheShore();
+        byHeatOfTheEmergencySet();
+        eachTimeIsCounted();
         Check.end("SheddingTest");
     }
 
@@ -125,6 +129,61 @@ public final class SheddingTest {
         Scene.run(x, 1);
         Check.same("but 20 later", x.look(at1, 0), Scene.SHED);
         Check.same("three times", x.count(4), 3);
+    }
+
+    /** "by groups that are live": of a dead one nothing is shed, low as it was. */
+    private static void deadGroupShedsNothing() {
+        ShipPower x = Scene.onShore(58000);
+        int first = Scene.asked(x, 0, 0, 10, 10);
+        int second = Scene.asked(x, 0, 1, 10, 10);
+        Scene.run(x, 1);
+        Check.same("tick 2", x.look(first, 0), Scene.SHED);
+        Scene.run(x, 8);
+        x.shore(false, 0);
+        Scene.run(x, 15);
+        Check.same("tick 25", x.look(second, 0), Scene.CONNECTED);
+        Check.same("one is shed", x.count(4), 1);
+    }
+
+    /** 40 more than its 600: 5000 in the 125th tick. */
+    private static void byHeatOfTheShore() {
+        ShipPower x = Scene.onShore(60000);
+        int light = Scene.asked(x, 0, 4, 40, 10);
+        for (int i = 0; i < 4; i++) {
+            Scene.asked(x, 0, 5, 150, 10);
+        }
+        Scene.run(x, 124);
+        Check.same("4960", x.set(5, 2), 4960);
+        Check.same("not yet", x.look(light, 0), Scene.CONNECTED);
+        Scene.run(x, 1);
+        Check.same("5000", x.set(5, 2), 5000);
+        Check.same("shed", x.look(light, 0), Scene.SHED);
+    }
+
+    private static void byHeatOfTheEmergencySet() {
+        ShipPower x = Scene.running(4);
+        int light = Scene.asked(x, 2, 3, 40, 10);
+        int other = Scene.asked(x, 0, 2, 40, 10);
+        Scene.asked(x, 2, 5, 150, 10);
+        Scene.asked(x, 2, 5, 50, 10);
+        Scene.run(x, 124);
+        Check.same("4960", x.set(4, 2), 4960);
+        Check.same("not yet", x.look(light, 0), Scene.CONNECTED);
+        Scene.run(x, 1);
+        Check.same("shed", x.look(light, 0), Scene.SHED);
+        Check.same("of another group", x.look(other, 0), Scene.WAITING);
+    }
+
+    /** A consumer that is shed twice counts twice. */
+    private static void eachTimeIsCounted() {
+        ShipPower x = Scene.onShore(58000);
+        int light = Scene.asked(x, 0, 0, 10, 10);
+        Scene.run(x, 1);
+        x.ask(light, true);
+        Scene.run(x, 20);
+        Check.same("shed again", x.look(light, 0), Scene.SHED);
+        Check.same("two", x.count(4), 2);
+        Check.same("two events", Scene.kept(x, 8, light), 2);
     }
 
     private static void onlyConnectedOnes() {

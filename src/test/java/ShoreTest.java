@@ -8,6 +8,8 @@ public final class ShoreTest {
         speedIsWhatWasTold();
         closesInStepOnly();
         parallel();
+        parallelIsBrokenOff();
+        parallelNeedsOneGroup();
         parallelWithNodeDead();
         Check.end("ShoreTest");
     }
@@ -167,6 +169,37 @@ public final class ShoreTest {
         Check.same("gone", Scene.state(x, 0), Scene.COOLING);
         Check.same("with 100 left", x.set(2, 6), 100);
         Check.same("the shore alone", x.bus(0, 4), 600);
+    }
+
+    /** "else none": after 150 ticks the tie is open for one, and 199 more are not enough. */
+    private static void parallelIsBrokenOff() {
+        ShipPower x = Scene.shoreTaken(60000);
+        x.fail(2, 0);
+        x.start(2);
+        x.tick();
+        Check.yes("2 comes", x.ticks(1000) < 1000);
+        Check.same("both", x.count(6), 192 | 4 | 32);
+        Scene.run(x, 149);
+        x.tie(false);
+        x.tick();
+        x.tie(true);
+        x.tick();
+        Check.same("in one group again", x.count(6), 192 | 4 | 32);
+        Scene.run(x, 198);
+        Check.same("199 ticks", Scene.state(x, 2), Scene.ON);
+        Scene.run(x, 1);
+        Check.same("200 ticks", Scene.state(x, 2), Scene.UNLOADING);
+    }
+
+    /** "are ON in one group": a main set at the other side of the open tie is none. */
+    private static void parallelNeedsOneGroup() {
+        ShipPower x = Scene.shoreTaken(60000);
+        x.fail(2, 0);
+        x.tie(false);
+        x.start(2);
+        Scene.run(x, 300);
+        Check.same("2 is ON", Scene.state(x, 2), Scene.ON);
+        Check.same("5 is ON", Scene.state(x, 5), Scene.ON);
     }
 
     private static void parallelWithNodeDead() {

@@ -4,7 +4,14 @@ public final class StartingTest {
         starting();
         noStart();
         noStartMended();
+        for (int how = 2; how < 5; how++) {
+            otherFailuresStart(how);
+        }
+        coolingAfterATrip();
+        coolingAfterUnloading();
+        coolingOfTheEmergencySet();
         idleAtDeadBus();
+        speedFalls();
         for (int delay = 60; delay < 160; delay++) {
             idleAtLiveBus(delay);
         }
@@ -58,6 +65,77 @@ public final class StartingTest {
         Scene.run(x, 1);
         Check.same("IDLE: tries 0", x.set(0, 7), 0);
         Check.same("IDLE", Scene.state(x, 0), Scene.IDLE);
+    }
+
+    /** "without that failure: IDLE" */
+    private static void otherFailuresStart(int how) {
+        ShipPower x = Scene.with();
+        x.fail(1, how);
+        x.start(1);
+        Scene.run(x, 29);
+        Check.same("STARTING with failure " + how, Scene.state(x, 1), Scene.STARTING);
+        Scene.run(x, 1);
+        Check.same("IDLE with failure " + how, Scene.kept(x, 1, 1), 1);
+        Check.same("no try with failure " + how, x.set(1, 7), 0);
+    }
+
+    private static void coolsFor(String what, ShipPower x, int set, int ticks) {
+        Check.same(what + ": COOLING", Scene.state(x, set), Scene.COOLING);
+        Check.same(what + ": left", x.set(set, 6), ticks);
+        Scene.run(x, ticks - 1);
+        Check.same(what + ": one tick left", x.set(set, 6), 1);
+        Check.same(what + ": COOLING still", Scene.state(x, set), Scene.COOLING);
+        Scene.run(x, 1);
+        Check.same(what + ": OFF", Scene.state(x, set), Scene.OFF);
+        Check.same(what + ": nothing left", x.set(set, 6), 0);
+    }
+
+    /** "COOLING: one tick less; with 0 left OFF." */
+    private static void coolingAfterATrip() {
+        ShipPower x = Scene.running(0, 2);
+        x.trip(2);
+        x.fail(2, Scene.NODE_DEAD);
+        coolsFor("trip", x, 2, 200);
+    }
+
+    private static void coolingAfterUnloading() {
+        ShipPower x = Scene.running(0, 1);
+        Scene.run(x, 209);
+        coolsFor("unloading", x, 1, 100);
+    }
+
+    private static void coolingOfTheEmergencySet() {
+        ShipPower x = Scene.with(4);
+        x.start(4);
+        Scene.run(x, 30);
+        x.fail(0, 0);
+        x.start(0);
+        Scene.run(x, 30 + 99);
+        coolsFor("emergency", x, 4, 100);
+    }
+
+    /** "the speed goes to the frequency of its bus and 100 .. by at most 20": down, and the last bit. */
+    private static void speedFalls() {
+        ShipPower x = Scene.running(0);
+        x.start(1);
+        Scene.run(x, 200);
+        Check.same("above the bus", x.set(1, 3), 60700);
+        // 1200 * 497 / 1000 is 596: the bus goes to 60004, and 60104 is 29 times 20 and 16 below.
+        Scene.burden(x, 497);
+        Scene.run(x, 1);
+        Check.same("the bus as it was ahead of this", x.set(1, 3), 60700);
+        Scene.run(x, 1);
+        Check.same("20 less", x.set(1, 3), 60680);
+        Scene.run(x, 28);
+        Check.same("the bus", x.bus(0, 0), 60004);
+        Check.same("29 times 20", x.set(1, 3), 60120);
+        Scene.run(x, 1);
+        Check.same("16 less", x.set(1, 3), 60104);
+        Scene.run(x, 1);
+        Check.same("no further", x.set(1, 3), 60104);
+        x.trip(0);
+        Scene.run(x, 6);
+        Check.same("to 60000 at a dead bus", x.set(1, 3), 60000);
     }
 
     private static void idleAtDeadBus() {
