@@ -2,7 +2,16 @@
 public final class BreakerTest {
     public static void main(String[] args) {
         stick();
-        tie();
+        stickNone();
+        stickOneAlone();
+        tieIsOpened();
+        tieIsOpenAlready();
+        tieIsClosedAlready();
+        tieIsOrdered();
+        tieIsOrderedAlready();
+        tieOrderIsGone();
+        tieSticksWhenToOpen();
+        tieSticksWhenOrdered();
         tieOfDeadSides();
         tieOfOneLiveSide();
         tieOfLiveSides();
@@ -17,53 +26,114 @@ public final class BreakerTest {
             Check.yes("sticks " + breaker, x.stick(breaker, true));
             Check.yes("again " + breaker, x.stick(breaker, true));
             Check.yes("no more " + breaker, x.stick(breaker, false));
+            Check.yes("nor before " + breaker, x.stick(breaker, false));
         }
-        Check.no("breaker -1", x.stick(-1, true));
-        Check.no("breaker 9", x.stick(9, true));
-        Check.no("breaker 38, whose bit is that of 6", x.stick(38, true));
         Check.yes("the tie opens", x.tie(false));
-
-        ShipPower y = Scene.with(0);
-        y.stick(0, true);
-        y.start(0);
-        Scene.run(y, 29);
-        Check.same("nothing was to close yet", y.count(8), 0);
-        Scene.run(y, 3);
-        Check.same("IDLE still", Scene.state(y, 0), Scene.IDLE);
-        Check.same("three ticks it was to close", y.count(8), 3);
-        y.stick(0, false);
-        Scene.run(y, 1);
-        Check.same("ON", Scene.state(y, 0), Scene.ON);
-        Check.same("no more than three", y.count(8), 3);
     }
 
-    private static void tie() {
+    /** "false if there is none such" */
+    private static void stickNone() {
         ShipPower x = new ShipPower();
-        Check.no("closed already", x.tie(true));
-        Check.same("no order of that", x.count(7), 0);
+        int[] wrong = {-1, 9, 32, 38, Integer.MAX_VALUE, Integer.MIN_VALUE};
+        for (int breaker : wrong) {
+            Check.no("breaker " + breaker, x.stick(breaker, true));
+            Check.no("not breaker " + breaker, x.stick(breaker, false));
+        }
+        Check.yes("the tie, whose bit is that of 38, opens", x.tie(false));
+    }
+
+    private static void stickOneAlone() {
+        ShipPower x = Scene.running(0, 1);
+        x.stick(0, true);
+        Check.yes("another one opens", x.trip(1));
+        Check.no("this one does not", x.trip(0));
+        x.stick(1, true);
+        x.stick(1, false);
+        Check.no("nor after that", x.trip(0));
+    }
+
+    /** "The tie is opened .. true" */
+    private static void tieIsOpened() {
+        ShipPower x = new ShipPower();
         Check.yes("opened", x.tie(false));
         Check.same("breaker 6 is open", x.count(6), 128);
         Check.same("an event", Scene.happened(x, 0), 1106);
+        Check.same("no order", x.count(7), 0);
+    }
+
+    /** "false if it is so already": open. */
+    private static void tieIsOpenAlready() {
+        ShipPower x = new ShipPower();
+        x.tie(false);
         Check.no("open already", x.tie(false));
-        Check.yes("ordered", x.tie(true));
-        Check.same("is told", x.count(7), 1);
-        Check.no("ordered already", x.tie(true));
-        Check.same("open as yet", x.count(6), 128);
-        Check.no("open already, but", x.tie(false));
-        Check.same("the order is gone", x.count(7), 0);
-        x.tick();
-        Check.same("it stays open", x.count(6), 128);
+        Check.same("one event", x.count(5), 1);
         x.stick(6, true);
         Check.no("open already, and sticks", x.tie(false));
         Check.same("it was not to open", x.count(8), 0);
-        Check.yes("the order may be given", x.tie(true));
+    }
 
-        ShipPower y = new ShipPower();
-        y.stick(6, true);
-        Check.no("sticks", y.tie(false));
-        Check.same("is counted", y.count(8), 1);
-        Check.same("closed", y.count(6), 192);
-        Check.same("no event", y.count(5), 0);
+    /** "false if it is so already": closed. */
+    private static void tieIsClosedAlready() {
+        ShipPower x = new ShipPower();
+        Check.no("closed already", x.tie(true));
+        Check.same("no order of that", x.count(7), 0);
+        x.stick(6, true);
+        Check.no("closed already, and sticks", x.tie(true));
+        Check.same("it was not to close", x.count(8), 0);
+    }
+
+    /** "or its closing is ORDERED": it is, and the tie is open until a tick. */
+    private static void tieIsOrdered() {
+        ShipPower x = new ShipPower();
+        x.tie(false);
+        int events = x.count(5);
+        Check.yes("ordered", x.tie(true));
+        Check.same("is told", x.count(7), 1);
+        Check.same("open as yet", x.count(6), 128);
+        Check.same("no event of that", x.count(5), events);
+    }
+
+    /** "false if it is so already": ordered. */
+    private static void tieIsOrderedAlready() {
+        ShipPower x = new ShipPower();
+        x.tie(false);
+        x.tie(true);
+        Check.no("ordered already", x.tie(true));
+        Check.same("ordered still", x.count(7), 1);
+        Check.same("it closes", x.tick(), 192);
+    }
+
+    /** "(with false an order is gone)" */
+    private static void tieOrderIsGone() {
+        ShipPower x = new ShipPower();
+        x.tie(false);
+        x.tie(true);
+        Check.no("open already", x.tie(false));
+        Check.same("the order is gone", x.count(7), 0);
+        Scene.run(x, 5);
+        Check.same("it stays open", x.count(6), 128);
+        Check.yes("it may be ordered anew", x.tie(true));
+    }
+
+    /** "or sticks when it is to be opened" */
+    private static void tieSticksWhenToOpen() {
+        ShipPower x = new ShipPower();
+        x.stick(6, true);
+        Check.no("sticks", x.tie(false));
+        Check.same("is counted", x.count(8), 1);
+        Check.same("closed", x.count(6), 192);
+        Check.same("no event", x.count(5), 0);
+        x.stick(6, false);
+        Check.yes("opens the next time", x.tie(false));
+    }
+
+    /** An order may be given while it sticks: it is only to close in a tick. */
+    private static void tieSticksWhenOrdered() {
+        ShipPower x = new ShipPower();
+        x.tie(false);
+        x.stick(6, true);
+        Check.yes("ordered", x.tie(true));
+        Check.same("not counted", x.count(8), 0);
     }
 
     private static void tieOfDeadSides() {

@@ -8,7 +8,8 @@ public final class BusTest {
         notLiveByOthers();
         liveByBus2();
         ratings();
-        wrongOnes();
+        noSuchBus();
+        noSuchWhat();
         Check.end("BusTest");
     }
 
@@ -137,12 +138,26 @@ public final class BusTest {
         Check.same("not at bus 1", shore.bus(1, 4), 0);
     }
 
-    private static void wrongOnes() {
+    /** "IndexOutOfBoundsException if there is no such bus or what" */
+    private static void noSuchBus() {
         ShipPower x = new ShipPower();
-        Check.refused("bus -1", IndexOutOfBoundsException.class, () -> x.bus(-1, 0));
-        Check.refused("bus 3", IndexOutOfBoundsException.class, () -> x.bus(3, 0));
-        Check.refused("what -1", IndexOutOfBoundsException.class, () -> x.bus(0, -1));
-        Check.refused("what 6", IndexOutOfBoundsException.class, () -> x.bus(0, 6));
-        Check.refused("far off", IndexOutOfBoundsException.class, () -> x.bus(Integer.MAX_VALUE, Integer.MIN_VALUE));
+        int[] wrong = {-1, 3, Integer.MAX_VALUE, Integer.MIN_VALUE};
+        for (int bus : wrong) {
+            for (int what = 0; what < 6; what++) {
+                int one = what;
+                Check.refused("bus " + bus, IndexOutOfBoundsException.class, () -> x.bus(bus, one));
+            }
+        }
+    }
+
+    private static void noSuchWhat() {
+        ShipPower x = new ShipPower();
+        int[] wrong = {-1, 6, Integer.MAX_VALUE, Integer.MIN_VALUE};
+        for (int what : wrong) {
+            for (int bus = 0; bus < 3; bus++) {
+                int one = bus;
+                Check.refused("what " + what, IndexOutOfBoundsException.class, () -> x.bus(one, what));
+            }
+        }
     }
 }

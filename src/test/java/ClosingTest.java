@@ -14,7 +14,6 @@ public final class ClosingTest {
         emergencyKeepsFeedersOpen();
         hundredTicksAheadOfIt();
         feedersChange();
-        feederSticks();
         neitherFeeder();
         Check.end("ClosingTest");
     }
@@ -213,27 +212,6 @@ public final class ClosingTest {
         Scene.run(x, 1);
         Check.same("fed from 0 again", x.count(6), 1 | 128);
         Check.same("live", x.bus(2, 5), 1);
-    }
-
-    private static void feederSticks() {
-        ShipPower x = twoSides();
-        x.stick(7, true);
-        x.trip(0);
-        Scene.run(x, 2);
-        Check.same("7 does not open, 8 does not close", x.count(6), 4 | 128);
-        Check.same("two ticks", x.count(8), 2);
-
-        ShipPower y = twoSides();
-        y.stick(8, true);
-        y.trip(0);
-        Scene.run(y, 1);
-        Check.same("7 opens, 8 does not close", y.count(6), 4);
-        Check.same("once in that tick", y.count(8), 1);
-        Scene.run(y, 1);
-        Check.same("and again", y.count(8), 2);
-        y.stick(8, false);
-        Scene.run(y, 1);
-        Check.same("8 closes", y.count(6), 4 | 256);
     }
 
     private static void neitherFeeder() {

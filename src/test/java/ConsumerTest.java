@@ -1,7 +1,10 @@
 /** Promises 4, 5 and 17: consumer, ask and look; what DEMAND is. */
 public final class ConsumerTest {
     public static void main(String[] args) {
-        wrongOnes();
+        noSuchBus();
+        noSuchClass();
+        kilowattsOutside();
+        factorOutside();
         edges();
         forty();
         askWhenDead();
@@ -17,7 +20,10 @@ public final class ConsumerTest {
         demandBeginsAnew();
         demandRoundsDown();
         demandOnlyIfConnected();
-        wrongNumbers();
+        askNoneSuch();
+        lookAtNoneSuch();
+        lookForNoSuchThing();
+        lookAtTheLast();
         Check.end("ConsumerTest");
     }
 
@@ -28,24 +34,43 @@ public final class ConsumerTest {
         Check.same("none made by " + call, x.count(3), 0);
     }
 
-    private static void wrongOnes() {
+    private static final int[] FAR_OFF = {Integer.MAX_VALUE, Integer.MIN_VALUE};
+
+    /** "IllegalArgumentException if there is no such bus" */
+    private static void noSuchBus() {
         bad(-1, 0, 10, 10);
         bad(3, 0, 10, 10);
-        bad(Integer.MIN_VALUE, 0, 10, 10);
-        bad(Integer.MAX_VALUE, 0, 10, 10);
+        for (int bus : FAR_OFF) {
+            bad(bus, 0, 10, 10);
+        }
+    }
+
+    /** ".. or class" */
+    private static void noSuchClass() {
         bad(0, -1, 10, 10);
         bad(0, 6, 10, 10);
-        bad(0, Integer.MIN_VALUE, 10, 10);
-        bad(0, Integer.MAX_VALUE, 10, 10);
+        for (int cls : FAR_OFF) {
+            bad(0, cls, 10, 10);
+        }
+    }
+
+    /** "kilowatts are not 1 .. 800" */
+    private static void kilowattsOutside() {
         bad(0, 0, 0, 10);
         bad(0, 0, -5, 10);
         bad(0, 0, 801, 10);
-        bad(0, 0, Integer.MAX_VALUE, 10);
+        for (int kilowatts : FAR_OFF) {
+            bad(0, 0, kilowatts, 10);
+        }
+    }
+
+    /** "or the factor not 10 .. 60" */
+    private static void factorOutside() {
         bad(0, 0, 10, 9);
         bad(0, 0, 10, 61);
-        bad(0, 0, Integer.MIN_VALUE, 10);
-        bad(0, 0, 10, Integer.MAX_VALUE);
-        bad(0, 0, 10, Integer.MIN_VALUE);
+        for (int factor : FAR_OFF) {
+            bad(0, 0, 10, factor);
+        }
     }
 
     private static void edges() {
@@ -286,16 +311,43 @@ public final class ConsumerTest {
         Check.same("the group's then", x.bus(0, 3), 0);
     }
 
-    private static void wrongNumbers() {
+    private static final int[] NONE_SUCH = {-1, 1, 40, Integer.MAX_VALUE, Integer.MIN_VALUE};
+
+    /** "IndexOutOfBoundsException if there is none such": only consumer 0 is there. */
+    private static void askNoneSuch() {
         ShipPower x = new ShipPower();
         x.consumer(0, 0, 1, 10);
-        int[] wrong = {-1, 1, 40, Integer.MAX_VALUE, Integer.MIN_VALUE};
-        for (int number : wrong) {
+        for (int number : NONE_SUCH) {
             Check.refused("ask " + number, IndexOutOfBoundsException.class, () -> x.ask(number, true));
             Check.refused("ask no more " + number, IndexOutOfBoundsException.class, () -> x.ask(number, false));
-            Check.refused("look " + number, IndexOutOfBoundsException.class, () -> x.look(number, 0));
         }
-        Check.refused("look what -1", IndexOutOfBoundsException.class, () -> x.look(0, -1));
-        Check.refused("look what 2", IndexOutOfBoundsException.class, () -> x.look(0, 2));
+    }
+
+    private static void lookAtNoneSuch() {
+        ShipPower x = new ShipPower();
+        x.consumer(0, 0, 1, 10);
+        for (int number : NONE_SUCH) {
+            Check.refused("look " + number, IndexOutOfBoundsException.class, () -> x.look(number, 0));
+            Check.refused("look " + number, IndexOutOfBoundsException.class, () -> x.look(number, 1));
+        }
+    }
+
+    private static void lookForNoSuchThing() {
+        ShipPower x = new ShipPower();
+        x.consumer(0, 0, 1, 10);
+        int[] wrong = {-1, 2, Integer.MAX_VALUE, Integer.MIN_VALUE};
+        for (int what : wrong) {
+            Check.refused("look what " + what, IndexOutOfBoundsException.class, () -> x.look(0, what));
+        }
+    }
+
+    private static void lookAtTheLast() {
+        ShipPower x = new ShipPower();
+        for (int i = 0; i < 40; i++) {
+            x.consumer(0, 0, 1, 10);
+        }
+        Check.same("its state", x.look(39, 0), 0);
+        Check.same("its demand", x.look(39, 1), 0);
+        Check.refused("the next", IndexOutOfBoundsException.class, () -> x.look(40, 0));
     }
 }

@@ -1,7 +1,8 @@
 /** Promise 18 and step 12: events, all kinds of them, the last 32. */
 public final class EventTest {
     public static void main(String[] args) {
-        wrongOnes();
+        notKept();
+        noSuchWhat();
         lastOnes();
         thirtyOneTwoThree();
         roundAndRound();
@@ -15,19 +16,30 @@ public final class EventTest {
         Check.refused("event(" + k + ", " + what + ")", IndexOutOfBoundsException.class, () -> x.event(k, what));
     }
 
-    private static void wrongOnes() {
+    /** "IndexOutOfBoundsException if it is not kept" */
+    private static void notKept() {
         ShipPower x = new ShipPower();
         bad(x, 0, 0);
         x.start(3);
         Check.same("its tick", x.event(0, 0), 0);
         Check.same("what it was", x.event(0, 1), 5);
         Check.same("whose", x.event(0, 2), 3);
-        bad(x, 1, 0);
-        bad(x, -1, 0);
-        bad(x, 0, -1);
-        bad(x, 0, 3);
-        bad(x, Integer.MIN_VALUE, 0);
-        bad(x, Integer.MAX_VALUE, 0);
+        int[] wrong = {-1, 1, 31, 32, Integer.MAX_VALUE, Integer.MIN_VALUE};
+        for (int k : wrong) {
+            for (int what = 0; what < 3; what++) {
+                bad(x, k, what);
+            }
+        }
+    }
+
+    /** "or there is no such what" */
+    private static void noSuchWhat() {
+        ShipPower x = new ShipPower();
+        x.start(3);
+        int[] wrong = {-1, 3, Integer.MAX_VALUE, Integer.MIN_VALUE};
+        for (int what : wrong) {
+            bad(x, 0, what);
+        }
     }
 
     private static void lastOnes() {

@@ -9,6 +9,7 @@ public final class ManagerTest {
         callsOnlyWhatItCan();
         callsForADeadGroup();
         callsByGroups();
+        bus2AloneCallsNothing();
         calmLooks();
         calmLooksAreBrokenOff();
         calmLooksEndWithACall();
@@ -168,6 +169,21 @@ public final class ManagerTest {
         Scene.run(x, 10);
         Check.same("one more for bus 1, of its own sets", Scene.state(x, 3), Scene.STARTING);
         Check.same("bus 0 has enough", Scene.state(x, 1), Scene.OFF);
+    }
+
+    /** "by groups in which main sets are (bus 0 or 1)": what bus 2 needs by itself calls none of them. */
+    private static void bus2AloneCallsNothing() {
+        ShipPower x = Scene.running(4);
+        x.fail(0, 0);
+        x.fail(1, 0);
+        for (int i = 0; i < 4; i++) {
+            Scene.asked(x, 2, 5, 199, 10);
+        }
+        x.stick(4, true);
+        Scene.run(x, 30);
+        Check.same("0 is called for the reserve", Scene.state(x, 0), Scene.STARTING);
+        Check.same("796 at bus 2", x.bus(2, 3), 796);
+        Check.same("1 is not called", Scene.state(x, 1), Scene.OFF);
     }
 
     private static void calmLooks() {

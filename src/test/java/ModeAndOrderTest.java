@@ -4,9 +4,13 @@ public final class ModeAndOrderTest {
 
     public static void main(String[] args) {
         modes();
+        noSuchMode();
         reserves();
         orders();
+        orderWithOneTwice();
+        orderWithOtherBits();
         orderIsUsed();
+        refusedOrderChangesNothing();
         Check.end("ModeAndOrderTest");
     }
 
@@ -14,11 +18,22 @@ public final class ModeAndOrderTest {
         ShipPower x = new ShipPower();
         for (int m = 0; m < 4; m++) {
             Check.yes("mode " + m, x.mode(m));
+            Check.yes("again " + m, x.mode(m));
         }
-        Check.no("mode -1", x.mode(-1));
-        Check.no("mode 4", x.mode(4));
-        Check.no("the greatest int", x.mode(Integer.MAX_VALUE));
-        Check.no("the least int", x.mode(Integer.MIN_VALUE));
+    }
+
+    /** "false if there is no such one" */
+    private static void noSuchMode() {
+        int[] wrong = {-1, 4, Integer.MAX_VALUE, Integer.MIN_VALUE};
+        for (int m : wrong) {
+            ShipPower x = Scene.running(0);
+            x.fail(1, 0);
+            x.mode(3);
+            Check.no("mode " + m, x.mode(m));
+            Scene.burden(x, 1);
+            Scene.run(x, 10);
+            Check.same("reserve 1000 as it was", Scene.state(x, 1), Scene.STARTING);
+        }
     }
 
     /** One set of 1000 is ON: a second one is called just above 1000 less the reserve. */
@@ -28,13 +43,6 @@ public final class ModeAndOrderTest {
             Check.no("mode " + m + " at its edge", callsWith(m, enough));
             Check.yes("mode " + m + " above it", callsWith(m, enough + 1));
         }
-        ShipPower x = Scene.running(0);
-        x.fail(1, 0);
-        x.mode(3);
-        x.mode(4);
-        Scene.asked(x, 0, 5, 1, 10);
-        Scene.run(x, 10);
-        Check.same("a refused mode changes nothing", Scene.state(x, 1), Scene.STARTING);
     }
 
     private static boolean callsWith(int mode, int demand) {
@@ -50,6 +58,7 @@ public final class ModeAndOrderTest {
         return a | b << 2 | c << 4 | d << 6;
     }
 
+    /** "two bits each, the first one lowest: true" */
     private static void orders() {
         ShipPower x = new ShipPower();
         int good = 0;
@@ -60,23 +69,44 @@ public final class ModeAndOrderTest {
         }
         Check.same("orders there are", good, 24);
         Check.yes("3 2 1 0", x.order(packed(3, 2, 1, 0)));
-        Check.no("0 1 2 2", x.order(packed(0, 1, 2, 2)));
-        Check.no("0 0 0 0", x.order(0));
-        Check.yes("other bits set", x.order(packed(1, 0, 3, 2) | 0xffffff00));
-        Check.no("other bits do not help", x.order(0xffffff00));
+    }
+
+    /** "false if one is there twice": at each two of the four places. */
+    private static void orderWithOneTwice() {
+        ShipPower x = new ShipPower();
+        Check.no("1st and 2nd", x.order(packed(0, 0, 2, 3)));
+        Check.no("1st and 3rd", x.order(packed(0, 1, 0, 3)));
+        Check.no("1st and 4th", x.order(packed(0, 1, 2, 0)));
+        Check.no("2nd and 3rd", x.order(packed(0, 1, 1, 3)));
+        Check.no("2nd and 4th", x.order(packed(0, 1, 2, 1)));
+        Check.no("3rd and 4th", x.order(packed(0, 1, 2, 2)));
+        Check.no("all", x.order(0));
+        Check.no("all, of 3", x.order(255));
+    }
+
+    /** "(Other bits are not looked at.)" */
+    private static void orderWithOtherBits() {
+        int[] others = {0x100, 0x80000000, 0x7fffff00, 0xffffff00};
+        for (int other : others) {
+            ShipPower x = new ShipPower();
+            Check.no("they do not help", x.order(other));
+            Check.yes("nor do they harm", x.order(packed(3, 0, 1, 2) | other));
+            Check.same("nor change the order", firstStarted(x), 3);
+        }
     }
 
     private static void orderIsUsed() {
         Check.same("as it was at first", firstStarted(NONE_GIVEN), 0);
+        Check.same("1 first", firstStarted(packed(1, 0, 3, 2)), 1);
         Check.same("2 first", firstStarted(packed(2, 0, 1, 3)), 2);
         Check.same("3 first", firstStarted(packed(3, 2, 1, 0)), 3);
+    }
+
+    private static void refusedOrderChangesNothing() {
         ShipPower x = new ShipPower();
         x.order(packed(2, 0, 1, 3));
-        x.order(packed(1, 1, 1, 1));
-        Check.same("a refused order changes nothing", firstStarted(x), 2);
-        x = new ShipPower();
-        x.order(packed(3, 0, 1, 2) | 0x7fffff00);
-        Check.same("other bits are not looked at", firstStarted(x), 3);
+        Check.no("refused", x.order(packed(1, 0, 3, 3)));
+        Check.same("2 first", firstStarted(x), 2);
     }
 
     private static final int NONE_GIVEN = -1;

@@ -2,6 +2,8 @@
 public final class SetCallsTest {
     public static void main(String[] args) {
         fail();
+        failOfNoSuchSet();
+        failOfNoSuchKind();
         failMendsBlocked();
         failLeavesTheRest();
         start();
@@ -13,10 +15,12 @@ public final class SetCallsTest {
         speedOnlyIfIdle();
         leftOnlyIfItCounts();
         triesOfASet();
-        wrongOnes();
+        noSuchSet();
+        noSuchWhat();
         Check.end("SetCallsTest");
     }
 
+    /** "A set 0 .. 4 has a failure from now on" */
     private static void fail() {
         ShipPower x = new ShipPower();
         for (int set = 0; set < 5; set++) {
@@ -25,15 +29,32 @@ public final class SetCallsTest {
                 Check.same("is told", x.set(set, 8), how);
             }
         }
-        Check.no("the shore does not fail", x.fail(5, 1));
-        Check.same("nor is it told so", x.set(5, 8), 0);
-        Check.no("set -1", x.fail(-1, 1));
-        Check.no("set 6", x.fail(6, 0));
-        Check.no("set far off", x.fail(Integer.MIN_VALUE, 0));
-        Check.no("failure far off", x.fail(0, Integer.MAX_VALUE));
-        Check.no("failure 5", x.fail(0, 5));
-        Check.no("failure -1", x.fail(0, -1));
-        Check.same("a refused one changes nothing", x.set(0, 8), 0);
+        Check.same("no events", x.count(5), 0);
+    }
+
+    /** "false if there is no such set" */
+    private static void failOfNoSuchSet() {
+        ShipPower x = new ShipPower();
+        int[] wrong = {-1, 5, 6, Integer.MAX_VALUE, Integer.MIN_VALUE};
+        for (int set : wrong) {
+            for (int how = 0; how < 5; how++) {
+                Check.no("set " + set, x.fail(set, how));
+            }
+        }
+        Check.same("the shore has none", x.set(5, 8), 0);
+    }
+
+    /** ".. or failure" */
+    private static void failOfNoSuchKind() {
+        ShipPower x = new ShipPower();
+        int[] wrong = {-1, 5, Integer.MAX_VALUE, Integer.MIN_VALUE};
+        for (int how : wrong) {
+            for (int set = 0; set < 5; set++) {
+                x.fail(set, 3);
+                Check.no("failure " + how, x.fail(set, how));
+                Check.same("as it was", x.set(set, 8), 3);
+            }
+        }
     }
 
     private static void failMendsBlocked() {
@@ -276,12 +297,26 @@ public final class SetCallsTest {
         Check.same("IDLE: no ticks left", y.set(0, 6), 0);
     }
 
-    private static void wrongOnes() {
+    /** "IndexOutOfBoundsException if there is no such set or what" */
+    private static void noSuchSet() {
         ShipPower x = new ShipPower();
-        Check.refused("set -1", IndexOutOfBoundsException.class, () -> x.set(-1, 0));
-        Check.refused("set 6", IndexOutOfBoundsException.class, () -> x.set(6, 0));
-        Check.refused("what -1", IndexOutOfBoundsException.class, () -> x.set(0, -1));
-        Check.refused("what 9", IndexOutOfBoundsException.class, () -> x.set(0, 9));
-        Check.refused("far off", IndexOutOfBoundsException.class, () -> x.set(Integer.MIN_VALUE, Integer.MAX_VALUE));
+        int[] wrong = {-1, 6, Integer.MAX_VALUE, Integer.MIN_VALUE};
+        for (int set : wrong) {
+            for (int what = 0; what < 9; what++) {
+                int one = what;
+                Check.refused("set " + set, IndexOutOfBoundsException.class, () -> x.set(set, one));
+            }
+        }
+    }
+
+    private static void noSuchWhat() {
+        ShipPower x = new ShipPower();
+        int[] wrong = {-1, 9, Integer.MAX_VALUE, Integer.MIN_VALUE};
+        for (int what : wrong) {
+            for (int set = 0; set < 6; set++) {
+                int one = set;
+                Check.refused("what " + what, IndexOutOfBoundsException.class, () -> x.set(one, what));
+            }
+        }
     }
 }

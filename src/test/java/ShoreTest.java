@@ -1,9 +1,17 @@
 /** Promises 12 and 13: shore and takeShore; sets in PARALLEL with the shore (step 10). */
 public final class ShoreTest {
     public static void main(String[] args) {
-        shore();
+        shoreRange();
+        shoreRefusedChangesNothing();
+        shoreGoneWithAnyFrequency();
         takeShore();
-        shoreGoes();
+        takeShoreThatIsNotThere();
+        takeShoreThatIsNotOff();
+        takeShoreBeginsAnew();
+        shoreGoesWhileOn();
+        shoreGoesWhileIdle();
+        shoreGoesWhileCooling();
+        shoreComesAgain();
         shoreGoesWhileItSticks();
         speedIsWhatWasTold();
         closesInStepOnly();
@@ -14,74 +22,158 @@ public final class ShoreTest {
         Check.end("ShoreTest");
     }
 
-    private static void shore() {
-        ShipPower x = new ShipPower();
-        Check.yes("least", x.shore(true, 55000));
-        Check.yes("most", x.shore(true, 65000));
-        Check.no("too little", x.shore(true, 54999));
-        Check.no("too much", x.shore(true, 65001));
-        Check.no("below 0", x.shore(true, -60000));
-        Check.yes("it is there as it was told last", x.takeShore());
-        Check.same("at that", x.set(5, 3), 65000);
-        Check.yes("gone, whatever else", x.shore(false, -1));
-        Check.yes("gone again", x.shore(false, Integer.MAX_VALUE));
-        Check.no("a refused one brings none", x.shore(true, 0));
-        Check.no("so it cannot be taken", x.takeShore());
+    /** "false if that is not 55000 .. 65000" */
+    private static void shoreRange() {
+        int[] good = {55000, 60000, 65000};
+        for (int milliHertz : good) {
+            ShipPower x = new ShipPower();
+            Check.yes("at " + milliHertz, x.shore(true, milliHertz));
+            Check.yes("there", x.takeShore());
+            Check.same("at that", x.set(5, 3), milliHertz);
+        }
+        int[] bad = {54999, 65001, 0, -60000, Integer.MAX_VALUE, Integer.MIN_VALUE};
+        for (int milliHertz : bad) {
+            ShipPower x = new ShipPower();
+            Check.no("at " + milliHertz, x.shore(true, milliHertz));
+            Check.no("none there", x.takeShore());
+        }
     }
 
+    private static void shoreRefusedChangesNothing() {
+        ShipPower x = new ShipPower();
+        x.shore(true, 61000);
+        Check.no("refused", x.shore(true, 65001));
+        Check.yes("there as it was", x.takeShore());
+        Check.same("at that", x.set(5, 3), 61000);
+        x.shore(false, 0);
+        Check.no("refused", x.shore(true, 54999));
+        Check.no("gone as it was", x.takeShore());
+    }
+
+    /** "(looked at only with true)" */
+    private static void shoreGoneWithAnyFrequency() {
+        int[] any = {60000, 54999, 65001, 0, -1, Integer.MAX_VALUE, Integer.MIN_VALUE};
+        for (int milliHertz : any) {
+            ShipPower x = new ShipPower();
+            x.shore(true, 60000);
+            Check.yes("gone, " + milliHertz, x.shore(false, milliHertz));
+            Check.no("none there", x.takeShore());
+            Check.yes("gone again, " + milliHertz, x.shore(false, milliHertz));
+        }
+    }
+
+    /** "Set 5, if the shore is there and it is OFF, is IDLE, its speed the shore's, its phase 0: true" */
     private static void takeShore() {
         ShipPower x = new ShipPower();
-        Check.no("none there", x.takeShore());
         x.shore(true, 60000);
         Check.yes("taken", x.takeShore());
         Check.same("IDLE", Scene.state(x, 5), Scene.IDLE);
         Check.same("speed", x.set(5, 3), 60000);
         Check.same("phase", x.set(5, 4), 0);
         Check.same("an event", Scene.happened(x, 0), 105);
-        Check.no("IDLE already", x.takeShore());
         x.tick();
         Check.same("ON, the bus being dead", Scene.state(x, 5), Scene.ON);
-        Check.no("ON already", x.takeShore());
         Check.same("capacity", x.bus(0, 4), 600);
+    }
+
+    private static void takeShoreThatIsNotThere() {
+        ShipPower x = new ShipPower();
+        Check.no("none there", x.takeShore());
+        x.shore(true, 60000);
+        x.shore(false, 0);
+        Check.no("gone", x.takeShore());
+        Check.same("OFF", Scene.state(x, 5), Scene.OFF);
+        Check.same("no events", x.count(5), 0);
+    }
+
+    private static void takeShoreThatIsNotOff() {
+        ShipPower x = new ShipPower();
+        x.shore(true, 60000);
+        x.takeShore();
+        Check.no("IDLE already", x.takeShore());
+        x.tick();
+        Check.no("ON already", x.takeShore());
         x.trip(5);
         Check.no("COOLING", x.takeShore());
-        Scene.run(x, 200);
+        Scene.run(x, 199);
+        Check.no("COOLING still", x.takeShore());
+        Scene.run(x, 1);
         Check.yes("OFF again", x.takeShore());
     }
 
-    private static void shoreGoes() {
+    /** "its phase 0": also the second time. */
+    private static void takeShoreBeginsAnew() {
+        ShipPower x = Scene.running(0);
+        Scene.run(x, 100);
+        x.shore(true, 60001);
+        x.takeShore();
+        Scene.run(x, 3);
+        Check.same("its phase", x.set(5, 4), 27);
+        x.shore(false, 0);
+        x.shore(true, 59000);
+        x.takeShore();
+        Check.same("its phase", x.set(5, 4), 0);
+        Check.same("its speed", x.set(5, 3), 59000);
+    }
+
+    /** "Without it set 5, if it is ON or UNLOADING, is OFF, its breaker open" */
+    private static void shoreGoesWhileOn() {
         ShipPower x = Scene.onShore(60000);
-        Scene.asked(x, 0, 5, 700, 10);
+        Scene.burden(x, 700);
+        Scene.run(x, 1);
+        Check.same("hot", x.set(5, 2), 100);
         int events = x.count(5);
         Check.yes("gone", x.shore(false, 0));
         Check.same("OFF", Scene.state(x, 5), Scene.OFF);
         Check.same("its breaker is open", x.count(6), 192);
         Check.same("no load", Scene.load(x, 5), 0);
+        Check.same("no heat once it left", x.set(5, 2), 0);
         Check.same("bus 0 is dead", x.bus(0, 0), 0);
         Check.same("no event of that", x.count(5), events);
-
-        ShipPower hot = Scene.onShore(60000);
-        for (int i = 0; i < 7; i++) {
-            Scene.asked(hot, 0, 5, 100, 10);
-        }
-        Scene.run(hot, 1);
-        Check.same("hot", hot.set(5, 2), 100);
-        hot.shore(false, 0);
-        Check.same("no heat once it left", hot.set(5, 2), 0);
-
-        ShipPower idle = new ShipPower();
-        idle.shore(true, 60000);
-        idle.takeShore();
-        idle.shore(false, 0);
-        Check.same("OFF if it was IDLE", Scene.state(idle, 5), Scene.OFF);
-
-        ShipPower cooling = Scene.onShore(60000);
-        cooling.trip(5);
-        cooling.shore(false, 0);
-        Check.same("a COOLING one stays", Scene.state(cooling, 5), Scene.COOLING);
-        Check.same("with what is left", cooling.set(5, 6), 200);
     }
 
+    /** "and it is OFF if it was IDLE" */
+    private static void shoreGoesWhileIdle() {
+        ShipPower x = new ShipPower();
+        x.shore(true, 60000);
+        x.takeShore();
+        x.shore(false, 0);
+        Check.same("OFF", Scene.state(x, 5), Scene.OFF);
+        x.tick();
+        Check.same("OFF still", Scene.state(x, 5), Scene.OFF);
+    }
+
+    private static void shoreGoesWhileCooling() {
+        ShipPower x = Scene.onShore(60000);
+        x.trip(5);
+        x.shore(false, 0);
+        Check.same("a COOLING one stays", Scene.state(x, 5), Scene.COOLING);
+        Check.same("with what is left", x.set(5, 6), 200);
+        Scene.run(x, 200);
+        Check.same("until it is OFF", Scene.state(x, 5), Scene.OFF);
+    }
+
+    /** "with it all stays" */
+    private static void shoreComesAgain() {
+        ShipPower x = Scene.onShore(60000);
+        int events = x.count(5);
+        x.shore(true, 61000);
+        Check.same("ON", Scene.state(x, 5), Scene.ON);
+        Check.same("the bus as it was", x.bus(0, 0), 60000);
+        x.trip(5);
+        x.shore(true, 60000);
+        Check.same("COOLING", x.set(5, 6), 200);
+        Scene.run(x, 200);
+        x.shore(true, 60500);
+        Check.same("OFF", Scene.state(x, 5), Scene.OFF);
+        x.takeShore();
+        x.shore(true, 60700);
+        Check.same("IDLE", Scene.state(x, 5), Scene.IDLE);
+        Check.same("its speed until a tick", x.set(5, 3), 60500);
+        Check.same("a trip, a ladder, an IDLE set", x.count(5), events + 3);
+    }
+
+    /** "its breaker open (also if it sticks)" */
     private static void shoreGoesWhileItSticks() {
         ShipPower x = Scene.onShore(60000);
         x.stick(5, true);
