@@ -10,6 +10,8 @@ public final class ManagerTest {
         callsForADeadGroup();
         callsByGroups();
         bus2AloneCallsNothing();
+        looksByGroups();
+        heavyOnesOfAnotherGroup();
         calmLooks();
         calmLooksAreBrokenOff();
         calmLooksEndWithACall();
@@ -18,6 +20,8 @@ public final class ManagerTest {
         calmOfALaterLead();
         emergencyIsNotComing();
         lastInOrderGoes();
+        lastOfThoseThatAreOn();
+        otherHasToBeOn();
         nodeDeadStays();
         nodeDeadCounts();
         startingAndIdleAreComing();
@@ -184,6 +188,52 @@ public final class ManagerTest {
         Check.same("0 is called for the reserve", Scene.state(x, 0), Scene.STARTING);
         Check.same("796 at bus 2", x.bus(2, 3), 796);
         Check.same("1 is not called", Scene.state(x, 1), Scene.OFF);
+    }
+
+    /** Both sides call in tick 20: that of bus 0 first. */
+    private static void looksByGroups() {
+        ShipPower x = shoreAtBus0(0, 2);
+        Scene.run(x, 20);
+        Check.same("2 is STARTING", Scene.happened(x, 0), 200000 + 502);
+        Check.same("0 was ahead of it", Scene.happened(x, 1), 200000 + 500);
+    }
+
+    /** "the first demands of HEAVY ones WAITING there": not of those at the other side. */
+    private static void heavyOnesOfAnotherGroup() {
+        ShipPower x = Scene.with(0);
+        x.tie(false);
+        x.start(0);
+        Scene.run(x, 30);
+        x.fail(1, 0);
+        Scene.asked(x, 1, 5, 720, 10);
+        Scene.run(x, 30);
+        Check.same("WAITING at bus 1", x.look(0, 0), Scene.WAITING);
+        Check.same("bus 0 has enough", Scene.state(x, 1), Scene.OFF);
+    }
+
+    /** Set 2 is UNLOADING and cannot leave: the last one that is ON is 1. */
+    private static void lastOfThoseThatAreOn() {
+        ShipPower x = Scene.running(0, 1, 2);
+        Scene.run(x, 190);
+        Check.same("2 goes", Scene.state(x, 2), Scene.UNLOADING);
+        x.stick(2, true);
+        Scene.run(x, 199);
+        Check.same("tick 419", Scene.state(x, 1), Scene.ON);
+        Scene.run(x, 1);
+        Check.same("tick 420", Scene.state(x, 1), Scene.UNLOADING);
+        Check.same("2 went once", Scene.kept(x, 6, 2), 1);
+    }
+
+    /** "at least one other of its sets 0 .. 3 is ON": 1 is UNLOADING and cannot leave, 2 is IDLE for good. */
+    private static void otherHasToBeOn() {
+        ShipPower x = Scene.running(0, 1);
+        Scene.run(x, 190);
+        Check.same("1 goes", Scene.state(x, 1), Scene.UNLOADING);
+        x.stick(1, true);
+        x.start(2);
+        Scene.run(x, 500);
+        Check.same("2 is IDLE", Scene.state(x, 2), Scene.IDLE);
+        Check.same("0 stays", Scene.state(x, 0), Scene.ON);
     }
 
     private static void calmLooks() {

@@ -6,7 +6,10 @@ public final class ProtectionTest {
         heatTrips();
         heatJustBelow();
         heatWhileItSticks();
+        heatByNumbers();
         watchEdge();
+        watchByNumbers();
+        watchBySumOfRatings();
         watchBelowTheEdge();
         watchRoundsDown();
         watchCountsOnlyOnes();
@@ -20,6 +23,8 @@ public final class ProtectionTest {
         lowFrequencyWhileItSticks();
         lowIsKeptForTheLead();
         lowEndsWithADeadGroup();
+        lowByGroups();
+        lowTripsUnloadingOnes();
         Check.end("ProtectionTest");
     }
 
@@ -86,6 +91,50 @@ public final class ProtectionTest {
         x.stick(0, false);
         Scene.run(x, 1);
         Check.same("then it trips", Scene.state(x, 0), Scene.COOLING);
+    }
+
+    /** "sets that are ON or UNLOADING, by numbers" */
+    private static void heatByNumbers() {
+        ShipPower x = Scene.running(0, 1, 2);
+        Scene.burden(x, 3600);
+        Scene.run(x, 99);
+        Check.same("19800", x.set(2, 2), 19800);
+        Scene.run(x, 1);
+        Check.same("2 is the last", Scene.happened(x, 0), 130 * 10000 + 302);
+        Check.same("then 1", Scene.happened(x, 1), 130 * 10000 + 301);
+        Check.same("then 0", Scene.happened(x, 2), 130 * 10000 + 300);
+    }
+
+    /** All three are off: 497 and 995 where 663 are due. With 0 gone, the others are too few to tell. */
+    private static void watchByNumbers() {
+        ShipPower x = Scene.running(0, 1, 2);
+        Scene.burden(x, 1990);
+        x.fail(1, Scene.HIGH);
+        Scene.run(x, 100);
+        Check.same("0 is the first", Scene.state(x, 0), Scene.BLOCKED);
+        Check.same("1 stays", Scene.state(x, 1), Scene.ON);
+        Check.same("2 stays", Scene.state(x, 2), Scene.ON);
+    }
+
+    /** The shore counts: 281 of 2600 are due, and 407 are 126 away of that; 732 make it 406. */
+    private static void watchBySumOfRatings() {
+        int[] demands = {732, 733};
+        int[] due = {Scene.ON, Scene.BLOCKED};
+        for (int i = 0; i < 2; i++) {
+            ShipPower x = Scene.shoreTaken(60000);
+            x.fail(0, 0);
+            x.fail(1, 0);
+            x.start(0);
+            x.start(1);
+            x.tick();
+            for (int k = 0; k < 300 && (Scene.state(x, 0) != Scene.ON || Scene.state(x, 1) != Scene.ON); k++) {
+                x.tick();
+            }
+            Scene.burden(x, demands[i]);
+            x.fail(1, Scene.HIGH);
+            Scene.run(x, 100);
+            Check.same("of " + demands[i], Scene.state(x, 1), due[i]);
+        }
     }
 
     /** Shares D/4, D/2, D/4 where D/3 each is due: D/6 is off by 125 with 750, by 126 with 756. */
@@ -309,6 +358,53 @@ public final class ProtectionTest {
         Check.same("19 ticks anew", Scene.state(x, 5), Scene.ON);
         Scene.run(x, 1);
         Check.same("20 ticks", Scene.state(x, 5), Scene.COOLING);
+    }
+
+    /** Shore and set 2 at 55000, as long as their breakers stick; the tie is open then. */
+    private static ShipPower bothSidesLow() {
+        ShipPower x = Scene.shoreTaken(60000);
+        x.fail(2, 0);
+        x.start(2);
+        x.ticks(1);
+        Check.yes("2 comes", x.ticks(1000) < 1000);
+        x.stick(5, true);
+        x.stick(2, true);
+        x.shore(true, 55000);
+        Scene.run(x, 130);
+        Check.same("55000", x.bus(1, 0), 55000);
+        x.tie(false);
+        return x;
+    }
+
+    /** "Group by group": that of bus 0 first. */
+    private static void lowByGroups() {
+        ShipPower x = bothSidesLow();
+        Scene.run(x, 19);
+        x.stick(5, false);
+        x.stick(2, false);
+        x.tick();
+        Check.same("2 is COOLING", Scene.happened(x, 0) % 10000, 302);
+        Check.same("5 was ahead of it", Scene.happened(x, 1) % 10000, 305);
+        Check.same("both in one tick", x.event(0, 0), x.event(1, 0));
+    }
+
+    /** "all sets of it": one that is UNLOADING trips with the others, and cools for 200. */
+    private static void lowTripsUnloadingOnes() {
+        ShipPower x = Scene.shoreTaken(60000);
+        x.fail(0, 0);
+        x.start(0);
+        x.tick();
+        Check.yes("0 comes", x.ticks(1000) < 1000);
+        x.stick(0, true);
+        Scene.run(x, 230);
+        Check.same("UNLOADING", Scene.state(x, 0), Scene.UNLOADING);
+        x.shore(true, 56999);
+        Scene.run(x, 94);
+        Check.same("low for 19 ticks", x.bus(0, 0), 56999);
+        x.stick(0, false);
+        x.tick();
+        Check.same("COOLING", Scene.state(x, 0), Scene.COOLING);
+        Check.same("by a trip", x.set(0, 6), 200);
     }
 
     /** Bus 1 is low for 11 ticks as a lead of its own, for 2 with bus 0 as its lead, and then for 9 again. */

@@ -11,6 +11,8 @@ public final class SheddingTest {
         deadGroupShedsNothing();
         byHeatOfTheShore();
         byHeatOfTheEmergencySet();
+        byHeatOfAnUnloadingSet();
+        heatOfAnotherGroup();
         eachTimeIsCounted();
         Check.end("SheddingTest");
     }
@@ -172,6 +174,44 @@ public final class SheddingTest {
         Scene.run(x, 1);
         Check.same("shed", x.look(light, 0), Scene.SHED);
         Check.same("of another group", x.look(other, 0), Scene.WAITING);
+    }
+
+    /** Set 0 is HIGH: 1077 of 1400, and the shore has 323. In the end 0 is sent away, hot as it is. */
+    private static void byHeatOfAnUnloadingSet() {
+        ShipPower x = Scene.shoreTaken(60000);
+        x.fail(0, 0);
+        x.start(0);
+        x.tick();
+        Check.yes("0 comes", x.ticks(1000) < 1000);
+        Scene.burden(x, 1400);
+        x.fail(0, Scene.HIGH);
+        Scene.run(x, 199);
+        Check.same("UNLOADING", Scene.state(x, 0), Scene.UNLOADING);
+        Check.yes("hot", x.set(0, 2) > 10000);
+        Check.same("the shore is not", x.set(5, 2), 0);
+        int light = Scene.asked(x, 0, 0, 10, 10);
+        Scene.run(x, 1);
+        Check.same("UNLOADING still", Scene.state(x, 0), Scene.UNLOADING);
+        Check.same("shed", x.look(light, 0), Scene.SHED);
+    }
+
+    /** "if a set of it has heat 5000 or more": of it, not of the other side. */
+    private static void heatOfAnotherGroup() {
+        ShipPower x = Scene.with(0, 2);
+        x.tie(false);
+        x.start(0);
+        x.start(2);
+        Scene.run(x, 30);
+        for (int i = 0; i < 11; i++) {
+            Scene.asked(x, 1, 5, 100, 10);
+        }
+        int light = Scene.asked(x, 0, 0, 10, 10);
+        Scene.run(x, 60);
+        Check.same("bus 1 is hot", x.set(2, 2), 6000);
+        Check.same("bus 0 is not", x.look(light, 0), Scene.CONNECTED);
+        int there = Scene.asked(x, 1, 0, 10, 10);
+        Scene.run(x, 1);
+        Check.same("of bus 1 it is shed", x.look(there, 0), Scene.SHED);
     }
 
     /** A consumer that is shed twice counts twice. */

@@ -18,6 +18,8 @@ public final class ShoreTest {
         parallel();
         parallelIsBrokenOff();
         parallelNeedsOneGroup();
+        parallelOnlyOfThoseThatAreOn();
+        parallelNotByUnloadingOnes();
         parallelWithNodeDead();
         Check.end("ShoreTest");
     }
@@ -260,6 +262,8 @@ public final class ShoreTest {
         Scene.run(x, 1);
         Check.same("gone", Scene.state(x, 0), Scene.COOLING);
         Check.same("with 100 left", x.set(2, 6), 100);
+        Check.same("by numbers: 2 is the last", Scene.happened(x, 0) % 10000, 302);
+        Check.same("0 was ahead of it", Scene.happened(x, 1) % 10000, 300);
         Check.same("the shore alone", x.bus(0, 4), 600);
     }
 
@@ -292,6 +296,55 @@ public final class ShoreTest {
         Scene.run(x, 300);
         Check.same("2 is ON", Scene.state(x, 2), Scene.ON);
         Check.same("5 is ON", Scene.state(x, 5), Scene.ON);
+    }
+
+    /** The shore, and sets 0 and 2, all ON in one group. */
+    private static ShipPower withBoth() {
+        ShipPower x = Scene.shoreTaken(60000);
+        x.mode(3);
+        Scene.asked(x, 0, 5, 10, 10);
+        x.fail(0, 0);
+        x.fail(2, 0);
+        x.start(0);
+        x.start(2);
+        x.tick();
+        Check.same("both come at once", x.ticks(1000) < 1000 ? x.count(6) : 0, 192 | 1 | 4 | 32);
+        return x;
+    }
+
+    /** "all these sets 0 .. 3": those ON. Set 0 is UNLOADING already when the turn of 2 comes. */
+    private static void parallelOnlyOfThoseThatAreOn() {
+        ShipPower x = withBoth();
+        x.fail(2, Scene.NODE_DEAD);
+        x.stick(0, true);
+        Scene.run(x, 199);
+        Check.same("0 goes", Scene.state(x, 0), Scene.UNLOADING);
+        Check.same("2 stays", Scene.state(x, 2), Scene.ON);
+        x.fail(2, 0);
+        Scene.run(x, 199);
+        Check.same("199 ticks", Scene.state(x, 2), Scene.ON);
+        Scene.run(x, 1);
+        Check.same("200 ticks", Scene.state(x, 2), Scene.UNLOADING);
+        Check.same("0 went once", Scene.kept(x, 6, 0), 1);
+    }
+
+    /** "If set 5 and sets 0 .. 3 are ON": one that is UNLOADING and cannot leave is not. */
+    private static void parallelNotByUnloadingOnes() {
+        ShipPower x = withBoth();
+        x.trip(2);
+        x.fail(2, Scene.NODE_DEAD);
+        x.stick(0, true);
+        Scene.run(x, 199);
+        Check.same("0 goes", Scene.state(x, 0), Scene.UNLOADING);
+        Scene.run(x, 100);
+        x.fail(2, 0);
+        x.start(2);
+        Check.yes("2 comes again", x.ticks(1000) < 1000);
+        Check.same("2 is ON again", Scene.state(x, 2), Scene.ON);
+        Scene.run(x, 198);
+        Check.same("199 ticks", Scene.state(x, 2), Scene.ON);
+        Scene.run(x, 1);
+        Check.same("200 ticks", Scene.state(x, 2), Scene.UNLOADING);
     }
 
     private static void parallelWithNodeDead() {
