@@ -27,7 +27,11 @@ final class Scene {
     static void run(ShipPower x, int ticks) {
         int left = ticks;
         while (left > 0) {
-            left -= x.ticks(Math.min(left, 1000));
+            int done = x.ticks(Math.min(left, 1000));
+            if (done < 1) {
+                throw new AssertionError("ticks() did " + done);
+            }
+            left -= done;
         }
     }
 
