@@ -95,7 +95,8 @@ public final class FaceTest {
     private static void fields() {
         for (Field f : ShipPower.class.getDeclaredFields()) {
             if (f.getName().equals("NONE")) {
-                Check.yes("NONE is a constant", Modifier.isPublic(f.getModifiers()) && Modifier.isFinal(f.getModifiers()));
+                Check.yes("NONE is public", Modifier.isPublic(f.getModifiers()));
+                Check.yes("NONE is a constant", Modifier.isFinal(f.getModifiers()));
             } else {
                 hidden(f);
             }

@@ -1,4 +1,4 @@
-/** Terms: a breaker that STICKS, in every way in which a breaker is to open or close, and a set that has left its bus. */
+/** Terms: a breaker that STICKS, in every way in which one is to open or close, and a set that has left its bus. */
 public final class StickingTest {
     private static final int[] AT = {0, 0, 1, 1, 2, 0};
 
