@@ -5,6 +5,9 @@ public final class BlackoutTest {
         whoIsCalledByOrder();
         whoCannotBeCalled();
         storedAndBroughtBack();
+        aClassEachTenTicks();
+        ladderEndsBelowClass0();
+        darkFrom20On();
         firstTwoOfAll();
         emergencyIsNotEnough();
         emergencyIsNotDark();
@@ -149,6 +152,56 @@ public final class BlackoutTest {
         Check.same("tick 391", x.look(c0, 0), Scene.CONNECTED);
         Check.same("its bus is dead", x.look(atBus1, 0), Scene.STORED);
         Check.same("two blackouts still", x.count(1), 2);
+    }
+
+    /** One STORED consumer of each class, the shore back in tick 33: the ladder is at 2, and class 5 is the first. */
+    private static ShipPower sixStored() {
+        ShipPower x = Scene.onShore(60000);
+        for (int cls = 0; cls < 6; cls++) {
+            Scene.asked(x, 0, cls, 10, 10);
+        }
+        x.shore(false, 0);
+        Scene.run(x, 31);
+        x.shore(true, 60000);
+        x.takeShore();
+        x.tick();
+        Check.same("at 2 in tick 33", x.count(0) * 10 + x.count(2), 332);
+        return x;
+    }
+
+    /** "in each tick whose number is a multiple of 10 .. the class is one less" */
+    private static void aClassEachTenTicks() {
+        ShipPower x = sixStored();
+        Scene.run(x, 6);
+        for (int cls = 5; cls >= 0; cls--) {
+            Check.same("class " + cls + " a tick ahead", x.look(cls, 0), Scene.STORED);
+            x.tick();
+            Check.same("class " + cls + " in tick " + x.count(0), x.look(cls, 0), Scene.WAITING);
+            Scene.run(x, 9);
+            Check.same("class " + cls + " then", x.look(cls, 0), Scene.CONNECTED);
+        }
+    }
+
+    /** "below 0 the ladder is at 0": with class 0, in tick 90. */
+    private static void ladderEndsBelowClass0() {
+        ShipPower x = sixStored();
+        Scene.run(x, 56);
+        Check.same("tick 89", x.count(2), 2);
+        x.tick();
+        Check.same("tick 90", x.count(2), 0);
+        Check.same("the event", Scene.happened(x, 0), 90 * 10000 + 1200);
+    }
+
+    /** "From 20 on" */
+    private static void darkFrom20On() {
+        ShipPower x = Scene.onShore(60000);
+        x.shore(false, 0);
+        Scene.run(x, 19);
+        Check.same("19 ticks", x.count(1), 0);
+        Scene.run(x, 1);
+        Check.same("20 ticks", x.count(1), 1);
+        Scene.run(x, 40);
+        Check.same("once", x.count(1), 1);
     }
 
     private static void emergencyIsNotEnough() {

@@ -13,6 +13,7 @@ public final class ManagerTest {
         looksByGroups();
         heavyOnesOfAnotherGroup();
         calmLooks();
+        calmBeginsAnew();
         calmLooksAreBrokenOff();
         calmLooksEndWithACall();
         calmNeedsAnother();
@@ -253,6 +254,17 @@ public final class ManagerTest {
         Check.same("its breaker", x.count(6), 193);
         Scene.run(x, 1000);
         Check.same("the last one stays", Scene.state(x, 0), Scene.ON);
+    }
+
+    /** "with 10 it is UNLOADING, and there is none": ten more looks for the next one. */
+    private static void calmBeginsAnew() {
+        ShipPower x = Scene.running(0, 1, 2);
+        Scene.run(x, 190);
+        Check.same("2 goes in tick 220", Scene.state(x, 2), Scene.UNLOADING);
+        Scene.run(x, 199);
+        Check.same("1 is ON in tick 419", Scene.state(x, 1), Scene.ON);
+        Scene.run(x, 1);
+        Check.same("1 goes in tick 420", Scene.state(x, 1), Scene.UNLOADING);
     }
 
     /** Coming less the rating is 1000: need 1000 is calm, 1001 is not. */

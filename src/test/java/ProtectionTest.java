@@ -13,12 +13,15 @@ public final class ProtectionTest {
         watchBelowTheEdge();
         watchRoundsDown();
         watchCountsOnlyOnes();
+        watchFrom100On();
         watchIsBrokenOff();
         watchForgetsWhatLeft();
         watchNeedsThree();
         watchWhileItSticks();
         watchIsNotOfTheShore();
-        lowFrequency();
+        lowIsBelow57000();
+        lowFrom20On();
+        lowIsBrokenOff();
         lowFrequencyTripsAll();
         lowFrequencyWhileItSticks();
         lowIsKeptForTheLead();
@@ -290,27 +293,49 @@ public final class ProtectionTest {
         Check.same("the shore is not looked at", Scene.state(x, 5), Scene.ON);
     }
 
-    private static void lowFrequency() {
+    /** "if the frequency is below 57000" */
+    private static void lowIsBelow57000() {
+        ShipPower x = Scene.shoreTaken(57000);
+        Scene.run(x, 60);
+        Check.same("57000 is not", Scene.state(x, 5), Scene.ON);
+        x.shore(true, 56999);
+        Scene.run(x, 60);
+        Check.same("56999 is", Scene.state(x, 5), Scene.COOLING);
+    }
+
+    /** "from 20 on all sets of it .. trip" */
+    private static void lowFrom20On() {
         ShipPower x = Scene.shoreTaken(56999);
         Scene.run(x, 19);
         Check.same("19 ticks", Scene.state(x, 5), Scene.ON);
         Scene.run(x, 1);
         Check.same("20 ticks", Scene.state(x, 5), Scene.COOLING);
         Check.same("200 left", x.set(5, 6), 200);
+    }
 
-        ShipPower edge = Scene.shoreTaken(57000);
-        Scene.run(edge, 60);
-        Check.same("57000 is not below", Scene.state(edge, 5), Scene.ON);
+    /** "else .. none" */
+    private static void lowIsBrokenOff() {
+        ShipPower x = Scene.shoreTaken(56999);
+        Scene.run(x, 15);
+        x.shore(true, 57000);
+        Scene.run(x, 1);
+        x.shore(true, 56999);
+        Scene.run(x, 19);
+        Check.same("19 ticks anew", Scene.state(x, 5), Scene.ON);
+        Scene.run(x, 1);
+        Check.same("20 ticks", Scene.state(x, 5), Scene.COOLING);
+    }
 
-        ShipPower broken = Scene.shoreTaken(56999);
-        Scene.run(broken, 15);
-        broken.shore(true, 57000);
-        Scene.run(broken, 1);
-        broken.shore(true, 56999);
-        Scene.run(broken, 19);
-        Check.same("19 ticks anew", Scene.state(broken, 5), Scene.ON);
-        Scene.run(broken, 1);
-        Check.same("20 ticks", Scene.state(broken, 5), Scene.COOLING);
+    /** "from 100 on its breaker opens, and it is BLOCKED" */
+    private static void watchFrom100On() {
+        ShipPower x = Scene.running(0, 1, 2);
+        Scene.burden(x, 900);
+        x.fail(0, Scene.HIGH);
+        Scene.run(x, 99);
+        Check.same("99 ticks", Scene.state(x, 0), Scene.ON);
+        Scene.run(x, 1);
+        Check.same("100 ticks", Scene.state(x, 0), Scene.BLOCKED);
+        Check.no("open", Scene.isClosed(x, 0));
     }
 
     private static void lowFrequencyTripsAll() {

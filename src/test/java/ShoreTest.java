@@ -14,6 +14,7 @@ public final class ShoreTest {
         shoreComesAgain();
         shoreGoesWhileItSticks();
         speedIsWhatWasTold();
+        busGoesToTheShore();
         closesInStepOnly();
         parallel();
         parallelIsBrokenOff();
@@ -21,6 +22,7 @@ public final class ShoreTest {
         parallelOnlyOfThoseThatAreOn();
         parallelNotByUnloadingOnes();
         parallelWithNodeDead();
+        parallelBeginsAnew();
         Check.end("ShoreTest");
     }
 
@@ -198,17 +200,20 @@ public final class ShoreTest {
         x.tick();
         Check.same("at once then", x.set(5, 3), 61000);
         Check.same("9 * 61000", x.set(5, 4), 9000);
+    }
 
-        ShipPower y = Scene.onShore(60000);
-        y.shore(true, 60100);
-        Check.same("the bus as it was", y.bus(0, 0), 60000);
-        y.tick();
-        Check.same("by 40", y.bus(0, 0), 60040);
-        Scene.run(y, 2);
-        Check.same("to what was told", y.bus(0, 0), 60100);
-        Scene.asked(y, 0, 5, 150, 10);
-        Scene.run(y, 5);
-        Check.same("whatever the load", y.bus(0, 0), 60100);
+    /** "but with set 5 among them the shore's frequency": by 40, and whatever the load. */
+    private static void busGoesToTheShore() {
+        ShipPower x = Scene.onShore(60000);
+        x.shore(true, 60100);
+        Check.same("the bus as it was", x.bus(0, 0), 60000);
+        x.tick();
+        Check.same("by 40", x.bus(0, 0), 60040);
+        Scene.run(x, 2);
+        Check.same("to what was told", x.bus(0, 0), 60100);
+        Scene.asked(x, 0, 5, 150, 10);
+        Scene.run(x, 5);
+        Check.same("whatever the load", x.bus(0, 0), 60100);
     }
 
     private static void closesInStepOnly() {
@@ -345,6 +350,22 @@ public final class ShoreTest {
         Check.same("199 ticks", Scene.state(x, 2), Scene.ON);
         Scene.run(x, 1);
         Check.same("200 ticks", Scene.state(x, 2), Scene.UNLOADING);
+    }
+
+    /** "with 200 .. and it is none": all being NODE DEAD, nothing goes, and 200 more are counted. */
+    private static void parallelBeginsAnew() {
+        ShipPower x = withBoth();
+        x.fail(0, Scene.NODE_DEAD);
+        x.fail(2, Scene.NODE_DEAD);
+        Scene.run(x, 200);
+        x.fail(0, 0);
+        x.fail(2, 0);
+        Scene.run(x, 198);
+        Check.same("399 ticks: 0", Scene.state(x, 0), Scene.ON);
+        Check.same("399 ticks: 2", Scene.state(x, 2), Scene.ON);
+        Scene.run(x, 1);
+        Check.same("400 ticks: 0", Scene.state(x, 0), Scene.UNLOADING);
+        Check.same("400 ticks: 2", Scene.state(x, 2), Scene.UNLOADING);
     }
 
     private static void parallelWithNodeDead() {

@@ -7,6 +7,7 @@ public final class StickingTest {
             setDoesNotClose(set);
             setDoesNotOpen(set);
         }
+        tieNeitherOpensNorCloses();
         feeder7DoesNotOpen();
         feeder7DoesNotClose();
         feeder8DoesNotOpen();
@@ -70,6 +71,21 @@ public final class StickingTest {
         x.stick(set, false);
         Check.yes("the next time it does " + set, x.trip(set));
         Check.same("once still " + set, x.count(8), 1);
+    }
+
+    private static void tieNeitherOpensNorCloses() {
+        ShipPower x = new ShipPower();
+        x.stick(6, true);
+        x.tie(false);
+        Check.yes("closed still", Scene.isClosed(x, 6));
+        x.stick(6, false);
+        x.tie(false);
+        Check.no("open", Scene.isClosed(x, 6));
+        x.tie(true);
+        x.stick(6, true);
+        x.tick();
+        Check.no("open still", Scene.isClosed(x, 6));
+        Check.same("twice", x.count(8), 2);
     }
 
     /** Sets 0 and 2, each at its side of the open tie; bus 2 is fed from bus 0. */
