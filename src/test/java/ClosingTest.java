@@ -15,6 +15,7 @@ public final class ClosingTest {
         hundredTicksAheadOfIt();
         feedersChange();
         neitherFeeder();
+        joinedBusKeepsItsOwn();
         Check.end("ClosingTest");
     }
 
@@ -240,5 +241,28 @@ public final class ClosingTest {
         Scene.run(y, 31);
         Check.same("7 sticks, and 8 is for a dead bus 0", y.count(6), 1 | 4);
         Check.same("two ticks", y.count(8), 2);
+    }
+
+    /** "Bus 2 is in step with what it is joined to by that", not the other way round: it ran at 60600. */
+    private static void joinedBusKeepsItsOwn() {
+        for (int bus = 0; bus < 2; bus++) {
+            int set = 2 * bus;
+            ShipPower x = Scene.with(set, 4);
+            x.tie(false);
+            x.start(4);
+            Scene.run(x, 5);
+            x.start(set);
+            Scene.asked(x, bus, 5, 100, 10);
+            Scene.run(x, 30 + 99);
+            Check.same("4 has left", Scene.state(x, 4), Scene.COOLING);
+            Check.same("60600 - 120", x.bus(bus, 0), 60480);
+            int phase = (x.bus(bus, 1) + 9 * 60480) % 180000;
+            Scene.run(x, 1);
+            Check.yes("joined", Scene.isClosed(x, 7 + bus));
+            Check.same("the frequency of bus " + bus, x.bus(bus, 0), 60480);
+            Check.same("the phase of bus " + bus, x.bus(bus, 1), phase);
+            Check.same("the frequency of bus 2", x.bus(2, 0), 60480);
+            Check.same("the phase of bus 2", x.bus(2, 1), phase);
+        }
     }
 }

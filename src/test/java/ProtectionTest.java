@@ -28,6 +28,7 @@ public final class ProtectionTest {
         lowEndsWithADeadGroup();
         lowByGroups();
         lowTripsUnloadingOnes();
+        lowOfBus2Alone();
         Check.end("ProtectionTest");
     }
 
@@ -458,5 +459,33 @@ public final class ProtectionTest {
         Check.same("low still", x.bus(1, 0), 55000 + 21 * 40);
         Scene.run(x, 1);
         Check.same("20 ticks", Scene.state(x, 2), Scene.COOLING);
+    }
+
+    /**
+     * Set 4 alone is brought below 57000 with so little above its rating that its heat stays below 20000; freed of
+     * all load it rises again, too late.
+     */
+    private static void lowOfBus2Alone() {
+        ShipPower x = Scene.running(4);
+        Scene.asked(x, 2, 5, 199, 10);
+        Scene.asked(x, 2, 5, 61, 10);
+        for (int i = 1; i <= 6; i++) {
+            Scene.asked(x, 2, 5, 67, 10);
+            Scene.run(x, 10);
+            Check.same("40 less each tick", x.bus(2, 0), 59040 - 400 * i);
+        }
+        Scene.asked(x, 2, 5, 67, 10);
+        Scene.run(x, 2);
+        Check.same("low for 11 ticks", x.bus(2, 0), 56560);
+        Check.yes("heat is " + x.set(4, 2), x.set(4, 2) < 20000);
+        for (int i = 0; i < x.count(3); i++) {
+            x.ask(i, false);
+        }
+        Scene.run(x, 8);
+        Check.same("19 ticks", Scene.state(x, 4), Scene.ON);
+        Check.same("40 more each tick", x.bus(2, 0), 56880);
+        Scene.run(x, 1);
+        Check.same("20 ticks", Scene.state(x, 4), Scene.COOLING);
+        Check.same("by a trip", x.set(4, 6), 200);
     }
 }
