@@ -10,6 +10,7 @@ public final class ClosingTest {
         emergencyGoes();
         emergencyGoesAfterEachOfHundred();
         emergencyGoesByBus0();
+        emergencyGoesWithNodeDead();
         emergencySticks();
         emergencyKeepsFeedersOpen();
         hundredTicksAheadOfIt();
@@ -145,6 +146,16 @@ public final class ClosingTest {
         Check.same("bus 0 99 times", Scene.state(x, 4), Scene.ON);
         Scene.run(x, 1);
         Check.same("a hundred times", Scene.state(x, 4), Scene.COOLING);
+    }
+
+    /** Step 3 makes no exception of a NODE DEAD set 4. */
+    private static void emergencyGoesWithNodeDead() {
+        ShipPower x = bothPlants();
+        x.fail(4, Scene.NODE_DEAD);
+        Scene.run(x, 98);
+        Check.same("99 ticks", Scene.state(x, 4), Scene.ON);
+        Scene.run(x, 1);
+        Check.same("100", Scene.state(x, 4), Scene.COOLING);
     }
 
     private static void emergencySticks() {

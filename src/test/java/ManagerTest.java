@@ -32,6 +32,7 @@ public final class ManagerTest {
         heavyFrom200();
         unloadingFallsBy50();
         unloadingSticks();
+        unloadingGoesOnWithNodeDead();
         Check.end("ManagerTest");
     }
 
@@ -484,6 +485,18 @@ public final class ManagerTest {
         Check.same("ticks 239 .. 245", x.count(8), 7);
         Check.same("it counts as capacity", x.bus(0, 4), 2000);
         x.stick(1, false);
+        Scene.run(x, 1);
+        Check.same("COOLING", Scene.state(x, 1), Scene.COOLING);
+    }
+
+    /** Step 10 makes no exception of NODE DEAD ones: what is UNLOADING goes on with it. */
+    private static void unloadingGoesOnWithNodeDead() {
+        ShipPower x = Scene.running(0, 1);
+        Scene.run(x, 195);
+        Check.same("weight", x.set(1, 5), 700);
+        x.fail(1, Scene.NODE_DEAD);
+        Scene.run(x, 13);
+        Check.same("weight", x.set(1, 5), 50);
         Scene.run(x, 1);
         Check.same("COOLING", Scene.state(x, 1), Scene.COOLING);
     }
