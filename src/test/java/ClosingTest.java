@@ -14,6 +14,7 @@ public final class ClosingTest {
         emergencySticks();
         emergencyKeepsFeedersOpen();
         hundredTicksAheadOfIt();
+        hundredTicksFromTheFirst();
         feedersChange();
         neitherFeeder();
         joinedBusKeepsItsOwn();
@@ -191,6 +192,26 @@ public final class ClosingTest {
         Check.same("COOLING", Scene.happened(x, 0), 289 * 10000 + 304);
         Check.same("ON", Scene.happened(x, 1), 289 * 10000 + 204);
         Check.same("IDLE", Scene.happened(x, 2), 289 * 10000 + 104);
+    }
+
+    /** Bus 1 is live from the first tick on: by the shore, and when that goes by set 2. */
+    private static void hundredTicksFromTheFirst() {
+        ShipPower x = Scene.with(2, 4);
+        x.shore(true, 59333);
+        x.takeShore();
+        x.start(2);
+        x.start(4);
+        Check.same("the shore closes in tick 1", x.ticks(100), 1);
+        Check.yes("2 comes in time", x.ticks(90) < 90);
+        Check.same("2 is ON", Scene.state(x, 2), Scene.ON);
+        x.tie(false);
+        x.shore(false, 0);
+        x.tick();
+        Check.same("4 is ON", Scene.state(x, 4), Scene.ON);
+        Scene.run(x, 99 - x.count(0));
+        Check.same("99 ticks", Scene.state(x, 4), Scene.ON);
+        Scene.run(x, 1);
+        Check.same("100", Scene.state(x, 4), Scene.COOLING);
     }
 
     /** Tie open, sets 0 and 2 ON, each at its side. */
